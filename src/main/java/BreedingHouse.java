@@ -23,12 +23,12 @@ public final class BreedingHouse {
 
     // Sorts of a tree's nodes.
     private static final int CONSTANT = 0;
-    private static final int X = 1;
-    private static final int Y = 2;
-    private static final int Z = 3;
-    private static final int N = 4;
-    private static final int S = 5;
-    private static final int E = 6;
+    private static final int INPUT_X = 1;
+    private static final int INPUT_Y = 2;
+    private static final int INPUT_Z = 3;
+    private static final int ROW_LENGTH = 4;
+    private static final int CARRIED = 5;
+    private static final int EACH = 6;
     private static final int LESS = 7;
     private static final int AT = 8;
     private static final int NOT = 9;
@@ -359,13 +359,15 @@ public final class BreedingHouse {
     public int edits(int b, int how) {
         Program p = birthAt(b);
         needHow(how);
-        return changer.count(p, null, how);
+        changer.begin(p, null, how);
+        return changer.count();
     }
 
     public int edit(int b, int how, int i) {
         Program p = birthAt(b);
         needHow(how);
-        if (i < 0 || !changer.pick(p, null, how, i)) {
+        changer.begin(p, null, how);
+        if (!changer.pick(i)) {
             throw new IndexOutOfBoundsException("no such edit");
         }
         needRoom(1);
@@ -378,12 +380,13 @@ public final class BreedingHouse {
             throw new IllegalArgumentException("no such how");
         }
         needRoom(1);
-        return changed(b, how, seed);
+        return bred(b, -1, how, seed);
     }
 
     public int pairs(int a, int b) {
         Program p = birthAt(a);
-        return changer.count(p, birthAt(b), 0);
+        changer.begin(p, birthAt(b), 0);
+        return changer.count();
     }
 
     public int cross(int a, int b, long seed) {
@@ -392,7 +395,7 @@ public final class BreedingHouse {
             throw new IllegalArgumentException("two kinds");
         }
         needRoom(1);
-        return crossed(a, b, seed);
+        return bred(a, b, -1, seed);
     }
 
     // ---- islands
@@ -553,8 +556,8 @@ public final class BreedingHouse {
         } else if (p.number < 0) {
             changer.out.copy(parent);
         } else {
-            Program mate = p.way == BY_CROSS ? birthAt(p.second) : null;
-            if (!changer.pick(parent, mate, p.how, p.number)) {
+            changer.begin(parent, p.way == BY_CROSS ? birthAt(p.second) : null, p.how);
+            if (!changer.pick(p.number)) {
                 return false;
             }
         }
@@ -754,7 +757,7 @@ public final class BreedingHouse {
     }
 
     private int bear(Program p, int way, int first, int second, int how, int number, long seed) {
-        Program child = new Program(p.size * p.width());
+        Program child = new Program(p.size * p.width);
         child.copy(p);
         child.way = way;
         child.first = first;
@@ -776,23 +779,22 @@ public final class BreedingHouse {
         return judge.runner.fault;
     }
 
-    private int changed(int b, int how, long seed) {
-        Program p = birthAt(b);
+    /** A child by change, or by cross if there is a second parent. */
+    private int bred(int a, int b, int how, long seed) {
+        Program p = birthAt(a);
         int number = -1;
         seeded.state = seed;
         if (how == REGROWTH) {
             changer.regrow(p, seeded, ranks);
         } else {
-            number = changer.drawn(p, null, how, seeded);
+            changer.begin(p, b < 0 ? null : birthAt(b), how);
+            int many = changer.count();
+            number = many > 0 ? seeded.draw(many) : -1;
+            if (!changer.pick(number)) {
+                changer.out.copy(p);
+            }
         }
-        return bear(changer.out, BY_CHANGE, b, -1, how, number, seed);
-    }
-
-    private int crossed(int a, int b, long seed) {
-        Program p = birthAt(a);
-        seeded.state = seed;
-        int number = changer.drawn(p, birthAt(b), 0, seeded);
-        return bear(changer.out, BY_CROSS, a, b, -1, number, seed);
+        return bear(changer.out, b < 0 ? BY_CHANGE : BY_CROSS, a, b, how, number, seed);
     }
 
     private void drawProgram(Stream stream, int kind, int size) {
@@ -838,11 +840,11 @@ public final class BreedingHouse {
             } else if (home.stream.draw(100) < settings[SET_CROSSING]) {
                 int a = home.choose(settings[SET_CHOICE], settings[SET_TOURNAMENT]);
                 int b = home.choose(settings[SET_CHOICE], settings[SET_TOURNAMENT]);
-                nextMembers[k] = crossed(a, b, home.stream.wide(1L << 62));
+                nextMembers[k] = bred(a, b, -1, home.stream.wide(1L << 62));
             } else {
                 int a = home.choose(settings[SET_CHOICE], settings[SET_TOURNAMENT]);
                 int how = home.stream.draw(kind == TREE ? REGROWTH + 1 : REGROWTH);
-                nextMembers[k] = changed(a, how, home.stream.wide(1L << 62));
+                nextMembers[k] = bred(a, -1, how, home.stream.wide(1L << 62));
             }
         }
         System.arraycopy(nextMembers, 0, home.birthOf, 0, home.count);
@@ -948,6 +950,8 @@ public final class BreedingHouse {
         int kind = TREE;
         int lines = 0;
         int size = 0;
+        /** How many numbers an item has: a state its output and edges, any other item two. */
+        int width = 2;
         int way = 0;
         int first = -1;
         int second = -1;
@@ -959,36 +963,31 @@ public final class BreedingHouse {
             items = new int[room > 0 ? room : 0];
         }
 
-        /** How many numbers an item has: a state its output and edges, any other item two. */
-        int width() {
-            return kind == MACHINE ? 1 + CLASSES : 2;
-        }
-
         void start(int newKind, int newLines) {
             kind = newKind;
             lines = newLines;
             size = 0;
+            width = newKind == MACHINE ? 1 + CLASSES : 2;
         }
 
         int get(int i, int what) {
-            int width = width();
             return i >= 0 && i < size && what >= 0 && what < width ? items[i * width + what] : 0;
         }
 
         void store(int i, int what, int v) {
-            int width = width();
             if (i >= 0 && i < size && what >= 0 && what < width) {
                 items[i * width + what] = v;
             }
         }
 
         boolean append(int a, int b) {
-            int width = width();
             int from = size * width;
             if (from + width > items.length) {
                 return false;
             }
-            Arrays.fill(items, from, from + width, 0);
+            for (int k = 2; k < width; k++) {
+                items[from + k] = 0;
+            }
             items[from] = a;
             items[from + 1] = b;
             size++;
@@ -996,9 +995,8 @@ public final class BreedingHouse {
         }
 
         boolean take(Program from, int begin, int end) {
-            int width = width();
             int many = end - begin;
-            if (from.width() != width || begin < 0 || many < 0 || end > from.size
+            if (from.width != width || begin < 0 || many < 0 || end > from.size
                     || (size + many) * width > items.length) {
                 return false;
             }
@@ -1009,15 +1007,17 @@ public final class BreedingHouse {
 
         void copy(Program from) {
             start(from.kind, from.lines);
-            take(from, 0, from.size);
+            if (from.size * width <= items.length) {
+                size = from.size;
+                System.arraycopy(from.items, 0, items, 0, size * width);
+            }
         }
 
         boolean alike(Program q) {
             if (kind != q.kind || lines != q.lines || size != q.size) {
                 return false;
             }
-            int many = size * width();
-            for (int k = 0; k < many; k++) {
+            for (int k = 0; k < size * width; k++) {
                 if (items[k] != q.items[k]) {
                     return false;
                 }
@@ -1053,7 +1053,11 @@ public final class BreedingHouse {
         void measure(Program p) {
             size = Math.min(p.size, MOST_ITEMS);
             for (int node = size - 1; node >= 0; node--) {
-                ends[node] = partAt(node, partsOf(p.get(node, 0)));
+                int end = node + 1;
+                for (int k = partsOf(p.get(node, 0)); k > 0; k--) {
+                    end = end < size ? ends[end] : size;
+                }
+                ends[node] = end;
             }
         }
 
@@ -1075,7 +1079,7 @@ public final class BreedingHouse {
         private void gather(int node, int sort) {
             tall[node] = 1;
             folds[node] = sort == FOLD;
-            loose[node] = sort == S || sort == E;
+            loose[node] = sort == CARRIED || sort == EACH;
             int at = node + 1;
             for (int k = 0; k < partsOf(sort) && at < size; k++) {
                 tall[node] = Math.max(tall[node], tall[at] + 1);
@@ -1096,14 +1100,14 @@ public final class BreedingHouse {
         }
 
         static int needs(int sort) {
-            if (sort <= N || sort == JUMP) {
+            if (sort <= ROW_LENGTH || sort == JUMP) {
                 return 0;
             }
             return sort >= CODE_PLUS && sort <= CODE_SAME || sort == SWAP ? 2 : 1;
         }
 
         static int grows(int sort) {
-            if (sort <= N || sort == DOUBLE) {
+            if (sort <= ROW_LENGTH || sort == DOUBLE) {
                 return 1;
             }
             return sort >= CODE_PLUS && sort <= CODE_SAME || sort == TAKE || sort == BRANCH ? -1 : 0;
@@ -1146,8 +1150,10 @@ public final class BreedingHouse {
         int number = 0;
         private Program program = null;
         private final Shape shape = new Shape();
-        private int[] facts = null;
-        private int from = 0;
+        private int x = 0;
+        private int y = 0;
+        private int z = 0;
+        private final int[] row = new int[MOST_ROW];
         private int length = 0;
         private int carried = 0;
         private int each = 0;
@@ -1161,16 +1167,18 @@ public final class BreedingHouse {
             }
         }
 
-        void perform(int[] row, int at) {
+        void perform(int[] facts, int from) {
             fault = 0;
             steps = 0;
             number = 0;
-            if (program == null || row == null || at < 0 || at + CASE_WIDTH > row.length) {
+            if (program == null || from < 0 || from + CASE_WIDTH > facts.length) {
                 return;
             }
-            facts = row;
-            from = at;
-            length = Math.min(row[at + CASE_LENGTH], MOST_ROW);
+            x = facts[from];
+            y = facts[from + 1];
+            z = facts[from + 2];
+            length = Math.min(facts[from + CASE_LENGTH], MOST_ROW);
+            System.arraycopy(facts, from + CASE_ROW, row, 0, MOST_ROW);
             int outcome = program.kind == TREE ? work(0, 1)
                     : program.kind == CODE ? runCode()
                     : program.kind == MACHINE ? runMachine() : runNet();
@@ -1186,16 +1194,23 @@ public final class BreedingHouse {
             return true;
         }
 
-        private int fact(int k) {
-            int at = from + k;
-            return facts != null && k >= 0 && k < CASE_WIDTH && at < facts.length ? facts[at] : 0;
-        }
-
         private int leaf(int sort, int constant) {
-            if (sort == CONSTANT) {
-                return constant;
+            switch (sort) {
+                case INPUT_X:
+                    return x;
+                case INPUT_Y:
+                    return y;
+                case INPUT_Z:
+                    return z;
+                case ROW_LENGTH:
+                    return length;
+                case CARRIED:
+                    return carried;
+                case EACH:
+                    return each;
+                default:
+                    return constant;
             }
-            return sort == N ? length : sort == S ? carried : sort == E ? each : fact(sort - X);
         }
 
         private int work(int node, int depth) {
@@ -1228,7 +1243,7 @@ public final class BreedingHouse {
             int result = begin;
             for (int k = 0; k < length && fault == 0; k++) {
                 carried = result;
-                each = fact(CASE_ROW + k);
+                each = row[k];
                 result = work(second, depth + 1);
             }
             return result;
@@ -1245,7 +1260,7 @@ public final class BreedingHouse {
                 fault = FAULT_PLACE;
                 return 0;
             }
-            return fact(CASE_ROW + a);
+            return row[a];
         }
 
         int two(int sort, int a, int b) {
@@ -1273,34 +1288,29 @@ public final class BreedingHouse {
             height = 0;
             int at = 0;
             for (int turn = 0; turn < MOST_ITEMS && at < program.size && fault == 0; turn++) {
-                if (step()) {
-                    at = instruct(at, program.get(at, 0), program.get(at, 1));
+                int sort = program.get(at, 0);
+                int argument = program.get(at, 1);
+                if (height < Shape.needs(sort) || height + Shape.grows(sort) > MOST_HEIGHT || !step()) {
+                    return 0;
                 }
+                if (sort <= ROW_LENGTH) {
+                    pile[height] = leaf(sort, argument);
+                } else if (sort <= CODE_AT) {
+                    pile[height - 1] = one(sort + 2, pile[height - 1]);
+                } else if (sort <= CODE_SAME) {
+                    pile[height - 2] = two(sort + 3, pile[height - 2], pile[height - 1]);
+                } else if (sort == DOUBLE) {
+                    pile[height] = pile[height - 1];
+                } else if (sort == SWAP) {
+                    int upper = pile[height - 1];
+                    pile[height - 1] = pile[height - 2];
+                    pile[height - 2] = upper;
+                }
+                height += Shape.grows(sort);
+                boolean passes = sort == JUMP || sort == BRANCH && pile[height] == 0;
+                at += passes ? 1 + argument : 1;
             }
             return height > 0 ? pile[height - 1] : 0;
-        }
-
-        /** Does an instruction and answers where it goes on. */
-        private int instruct(int at, int sort, int argument) {
-            if (height < Shape.needs(sort) || height + Shape.grows(sort) > MOST_HEIGHT) {
-                return program.size;
-            }
-            if (sort <= N) {
-                pile[height] = leaf(sort, argument);
-            } else if (sort <= CODE_AT) {
-                pile[height - 1] = one(sort + 2, pile[height - 1]);
-            } else if (sort <= CODE_SAME) {
-                pile[height - 2] = two(sort + 3, pile[height - 2], pile[height - 1]);
-            } else if (sort == DOUBLE) {
-                pile[height] = pile[height - 1];
-            } else if (sort == SWAP) {
-                int upper = pile[height - 1];
-                pile[height - 1] = pile[height - 2];
-                pile[height - 2] = upper;
-            }
-            height += Shape.grows(sort);
-            boolean passes = sort == JUMP || sort == BRANCH && pile[height] == 0;
-            return at + 1 + (passes ? argument : 0);
         }
 
         private int runMachine() {
@@ -1308,7 +1318,7 @@ public final class BreedingHouse {
             int state = 0;
             for (int k = 0; k < length && fault == 0; k++) {
                 if (step()) {
-                    state = program.get(state, 1 + Math.floorMod(fact(CASE_ROW + k), CLASSES));
+                    state = program.get(state, 1 + Math.floorMod(row[k], CLASSES));
                 }
             }
             return program.get(state, 0);
@@ -1317,7 +1327,7 @@ public final class BreedingHouse {
         private int runNet() {
             step();
             for (int k = 0; k < MOST_ROW; k++) {
-                pile[k] = k < length ? fact(CASE_ROW + k) : 0;
+                pile[k] = k < length ? row[k] : 0;
             }
             for (int c = 0; c < program.size && fault == 0; c++) {
                 if (step()) {
@@ -1369,6 +1379,18 @@ public final class BreedingHouse {
 
         boolean counts(int k, boolean hidden) {
             return (fact(k, CASE_HIDDEN) != 0) == hidden;
+        }
+
+        /** Numbers the seen cases into a row of numbers: how many there are. */
+        int listSeen(int[] into) {
+            int seen = 0;
+            for (int k = 0; k < count && seen < into.length; k++) {
+                if (counts(k, false)) {
+                    into[seen] = k;
+                    seen++;
+                }
+            }
+            return seen;
         }
 
         static int gap(int a, int b) {
@@ -1451,10 +1473,12 @@ public final class BreedingHouse {
         private final long[] costs = new long[MOST_MEMBERS];
         private final int[] sizes = new int[MOST_MEMBERS];
         private final int[] errors = new int[MOST_MEMBERS * MOST_CASES];
+        private final int[] seenCases = new int[MOST_CASES];
         private final int[] order = new int[MOST_CASES];
 
         /** Nothing of scores is kept from call to call, so each call looks first. */
         void look(Program[] births, Judge judge) {
+            seen = judge.listSeen(seenCases);
             for (int place = 0; place < count; place++) {
                 int b = birthOf[place];
                 Program p = b >= 0 && b < births.length ? births[b] : null;
@@ -1462,22 +1486,11 @@ public final class BreedingHouse {
                     judge.runner.load(p);
                     sizes[place] = p.size;
                     costs[place] = 0;
-                    lookAt(place, judge);
                 }
-            }
-            seen = 0;
-            for (int k = 0; k < judge.count; k++) {
-                seen += judge.counts(k, false) ? 1 : 0;
-            }
-        }
-
-        private void lookAt(int place, Judge judge) {
-            int at = place * MOST_CASES;
-            for (int k = 0; k < judge.count; k++) {
-                if (judge.counts(k, false)) {
-                    errors[at] = judge.errorOn(k);
-                    costs[place] += (long) judge.fact(k, CASE_WEIGHT) * errors[at];
-                    at++;
+                for (int k = 0; p != null && k < seen; k++) {
+                    int error = judge.errorOn(seenCases[k]);
+                    errors[place * MOST_CASES + k] = error;
+                    costs[place] += (long) judge.fact(seenCases[k], CASE_WEIGHT) * error;
                 }
             }
         }
@@ -1580,7 +1593,15 @@ public final class BreedingHouse {
             for (int k = 0; k < seen; k++) {
                 left = narrowed(left, order[k]);
             }
-            return Integer.numberOfTrailingZeros(left);
+            return leastOf(left);
+        }
+
+        private int leastOf(int mask) {
+            int place = 0;
+            while (place < count && (mask >> place & 1) == 0) {
+                place++;
+            }
+            return place;
         }
 
         /** Of the members with a bit in a mask those with the least error at a seen case. */
@@ -1604,7 +1625,7 @@ public final class BreedingHouse {
                 return 0;
             }
             if (cases == 0 || Integer.bitCount(mask) == 1) {
-                return Integer.numberOfTrailingZeros(mask) == place ? orders(Integer.bitCount(cases)) : 0;
+                return leastOf(mask) == place ? orders(Integer.bitCount(cases)) : 0;
             }
             int many = 0;
             for (int k = 0; k < 6; k++) {
@@ -1713,8 +1734,15 @@ public final class BreedingHouse {
         }
 
         private int digits() {
-            int d = digit(0, 9);
-            return wrong < 0 && isDigit(peek()) ? 10 * d + digit(0, 9) : d;
+            int d = 0;
+            if (wrong >= 0 || !isDigit(peek())) {
+                fail();
+            }
+            for (int k = 0; k < 2 && wrong < 0 && isDigit(peek()); k++) {
+                d = 10 * d + peek() - '0';
+                at++;
+            }
+            return d;
         }
 
         private int constant() {
@@ -1734,7 +1762,7 @@ public final class BreedingHouse {
             } else if (c == '(') {
                 at++;
                 branching(truth, depth, inner);
-            } else if (truth || leaf >= S && !inner) {
+            } else if (truth || leaf >= CARRIED && !inner) {
                 fail();
             } else if (leaf > 0) {
                 at++;
@@ -1960,7 +1988,7 @@ public final class BreedingHouse {
         private static boolean allowed(int context, int sort) {
             int zone = context / 2 * 2;
             return isTruth(sort) == (context % 2 == 1)
-                    && (zone == INNER || sort != S && sort != E) && (zone == FREE || sort != FOLD);
+                    && (zone == INNER || sort != CARRIED && sort != EACH) && (zone == FREE || sort != FOLD);
         }
 
         /** How many trees have a sort at node 0, by what is known of lesser sizes. */
@@ -2116,14 +2144,10 @@ public final class BreedingHouse {
         /** The place, among trees without folds, of the least that is right on all seen cases; -1 without one. */
         int sought(Judge by, int most) {
             judge = by;
-            seen = 0;
-            for (int k = 0; k < judge.count; k++) {
-                if (judge.counts(k, false)) {
-                    seenCases[seen] = k;
-                    if (values[seen] == null) {
-                        values[seen] = new long[SEARCH_ROOM];
-                    }
-                    seen++;
+            seen = judge.listSeen(seenCases);
+            for (int k = 0; k < seen; k++) {
+                if (values[k] == null) {
+                    values[k] = new long[SEARCH_ROOM];
                 }
             }
             int found = -1;
@@ -2186,7 +2210,7 @@ public final class BreedingHouse {
             int number = seenCases[k];
             int length = judge.fact(number, CASE_LENGTH);
             if (sort < LESS) {
-                return sort == CONSTANT ? a : sort == N ? length : judge.fact(number, sort - X);
+                return sort == CONSTANT ? a : sort == ROW_LENGTH ? length : judge.fact(number, sort - INPUT_X);
             }
             long v = values[k][a];
             long w = sort < PLUS ? 0 : values[k][b];
@@ -2202,6 +2226,12 @@ public final class BreedingHouse {
 
     /** Makes the edits of a program and the pairs of two. */
     private static final class Changer {
+        // A recipe is so many times the kind, and the how, or this for pairs.
+        private static final int HOWS = 5;
+        private static final int PAIR = 4;
+        private static final int NUDGES = 5;
+        private static final int CODE_CHANGEABLE = 14;
+
         final Program out = new Program(2 * MOST_ITEMS);
         private final Program part = new Program(2 * MOST_ITEMS);
         private final Shape shape = new Shape();
@@ -2209,35 +2239,72 @@ public final class BreedingHouse {
         private final Shape check = new Shape();
         private Program base = null;
         private Program mate = null;
-        private int how = 0;
+        private int recipe = 0;
+        private int across = 1;
+        private int candidates = 0;
+        private Program graft = null;
+        private int graftFrom = 0;
+        private int graftTo = 0;
 
-        /** How many candidates there are for edits, or pairs if there is a mate; made() tells which are. */
-        int begin(Program p, Program q, int by) {
+        /** How many candidates there are for edits, or for pairs with a mate; made() tells which are some. */
+        int begin(Program p, Program q, int how) {
             base = p;
             mate = q;
-            how = by;
+            recipe = HOWS * p.kind + (q == null ? how : PAIR);
             if (p.kind == TREE) {
                 shape.ofTree(p);
             }
-            if (q == null) {
-                return p.kind == TREE ? treeEdits() : p.kind == CODE ? codeEdits()
-                        : p.kind == MACHINE ? machineEdits() : netEdits();
-            }
-            if (p.kind != q.kind || p.lines != q.lines || p.kind == MACHINE && p.size != q.size) {
-                return 0;
-            }
-            if (p.kind == TREE) {
+            if (q != null && p.kind == TREE && q.kind == TREE) {
                 mateShape.ofTree(q);
-            } else if (p.kind == CODE) {
+            }
+            if (q != null && p.kind == CODE && q.kind == CODE) {
                 shape.ofCode(p);
                 mateShape.ofCode(q);
             }
-            return p.kind == MACHINE ? (1 << p.size) - 2
-                    : p.kind == TREE ? p.size * q.size : (p.size + 1) * (q.size + 1);
+            candidates = q == null ? editCandidates(how) : pairCandidates();
+            return candidates;
         }
 
-        int count(Program p, Program q, int by) {
-            int candidates = begin(p, q, by);
+        private int editCandidates(int how) {
+            int size = base.size;
+            across = base.kind == MACHINE ? size : base.kind == NET ? base.lines * (base.lines - 1) / 2 : 1;
+            switch (recipe) {
+                case HOWS * TREE + 1:
+                    return SORTS * size;
+                case HOWS * TREE + 2:
+                case HOWS * TREE + 3:
+                case HOWS * CODE + 2:
+                    return 3 * size;
+                case HOWS * CODE + 1:
+                    return CODE_CHANGEABLE * size;
+                case HOWS * CODE + 3:
+                    return NUDGES * (size + 1);
+                case HOWS * MACHINE + 1:
+                    return CLASSES * size * size;
+                case HOWS * MACHINE + 2:
+                    return size < MOST_STATES ? CLASSES * size : 0;
+                case HOWS * NET:
+                    return size * across;
+                case HOWS * NET + 1:
+                    return size;
+                case HOWS * NET + 2:
+                    return size < MOST_COMPARATORS ? (size + 1) * across : 0;
+                default:
+                    return how == 0 ? NUDGES * size : size - 1;
+            }
+        }
+
+        private int pairCandidates() {
+            if (base.kind != mate.kind || base.lines != mate.lines || base.kind == MACHINE && base.size != mate.size) {
+                return 0;
+            }
+            across = base.kind == TREE ? mate.size : mate.size + 1;
+            return base.kind == MACHINE ? (1 << base.size) - 2
+                    : base.kind == TREE ? base.size * across : (base.size + 1) * across;
+        }
+
+        /** How many of the candidates are edits or pairs. */
+        int count() {
             int many = 0;
             for (int c = 0; c < candidates; c++) {
                 many += made(c) ? 1 : 0;
@@ -2245,10 +2312,10 @@ public final class BreedingHouse {
             return many;
         }
 
-        boolean pick(Program p, Program q, int by, int number) {
-            int candidates = begin(p, q, by);
+        /** Makes the edit or pair with a number, if there is one. */
+        boolean pick(int number) {
             int left = number;
-            for (int c = 0; c < candidates; c++) {
+            for (int c = 0; c < candidates && left >= 0; c++) {
                 if (made(c)) {
                     if (left == 0) {
                         return true;
@@ -2259,43 +2326,53 @@ public final class BreedingHouse {
             return false;
         }
 
-        /** Makes the edit or pair that is drawn and answers its number; without any out is as p, and -1. */
-        int drawn(Program p, Program q, int by, Stream stream) {
-            int many = count(p, q, by);
-            int number = many > 0 ? stream.draw(many) : -1;
-            if (number < 0 || !pick(p, q, by, number)) {
-                out.copy(p);
-            }
-            return number;
-        }
-
-        /** Makes a candidate, if it is an edit or a pair. */
+        /** Makes a candidate in out, if it is an edit or a pair. */
         boolean made(int c) {
-            boolean formed = mate != null ? pairMade(c)
-                    : base.kind == TREE ? treeMade(c) : base.kind == CODE ? codeMade(c)
-                    : base.kind == MACHINE ? machineMade(c) : netMade(c);
-            return formed && (base.kind != CODE || check.ofCode(out) < 0);
-        }
-
-        private int treeEdits() {
-            return base.size * (how == 0 ? 5 : how == 1 ? SORTS : 3);
-        }
-
-        private int codeEdits() {
-            return how == 0 ? 5 * base.size : how == 1 ? 14 * base.size
-                    : how == 2 ? 3 * base.size : 5 * (base.size + 1);
-        }
-
-        private int machineEdits() {
-            int edges = CLASSES * base.size;
-            return how == 0 ? 5 * base.size : how == 1 ? edges * base.size
-                    : how == 3 ? base.size - 1 : base.size < MOST_STATES ? edges : 0;
-        }
-
-        private int netEdits() {
-            int comparators = base.lines * (base.lines - 1) / 2;
-            return how == 0 ? base.size * comparators : how == 1 ? base.size
-                    : how == 3 ? base.size - 1 : base.size < MOST_COMPARATORS ? (base.size + 1) * comparators : 0;
+            if (across < 1) {
+                return false;
+            }
+            switch (recipe) {
+                case HOWS * TREE:
+                    return base.get(c / NUDGES, 0) == CONSTANT && nudged(c / NUDGES, 1, c % NUDGES);
+                case HOWS * TREE + 1:
+                    return resorted(c / SORTS, c % SORTS);
+                case HOWS * TREE + 2:
+                    return leafFits(c / 3, c % 3) && grafted(c / 3);
+                case HOWS * TREE + 3:
+                    return partFits(c / 3, c % 3) && grafted(c / 3);
+                case HOWS * TREE + PAIR:
+                    return nodesFit(c / across, c % across) && grafted(c / across);
+                case HOWS * CODE:
+                    return base.get(c / NUDGES, 0) == CONSTANT && nudged(c / NUDGES, 1, c % NUDGES);
+                case HOWS * CODE + 1:
+                    return reinstructed(c / CODE_CHANGEABLE, c % CODE_CHANGEABLE);
+                case HOWS * CODE + 2:
+                    return leftOut(c / 3, c % 3 + 1) && check.ofCode(out) < 0;
+                case HOWS * CODE + 3:
+                    return inserted(c / NUDGES, c % NUDGES) && check.ofCode(out) < 0;
+                case HOWS * CODE + PAIR:
+                    return joined(c / across, c % across) && check.ofCode(out) < 0;
+                case HOWS * MACHINE:
+                    return nudged(c / NUDGES, 0, c % NUDGES);
+                case HOWS * MACHINE + 1:
+                    return edgeMoved(c / across, c % across);
+                case HOWS * MACHINE + 2:
+                    return stateAdded(c);
+                case HOWS * MACHINE + 3:
+                    return stateLeftOut(c + 1);
+                case HOWS * MACHINE + PAIR:
+                    return statesMixed(c + 1);
+                case HOWS * NET:
+                    return comparatorPut(c / across, c % across, 1);
+                case HOWS * NET + 1:
+                    return comparatorLeftOut(c);
+                case HOWS * NET + 2:
+                    return comparatorPut(c / across, c % across, 0);
+                case HOWS * NET + 3:
+                    return comparatorsSwapped(c);
+                default:
+                    return joined(c / across, c % across) && out.size <= MOST_COMPARATORS;
+            }
         }
 
         /** Makes a constant another one in one of five ways. */
@@ -2310,16 +2387,6 @@ public final class BreedingHouse {
             return true;
         }
 
-        private boolean treeMade(int c) {
-            if (how == 0) {
-                return base.get(c / 5, 0) == CONSTANT && nudged(c / 5, 1, c % 5);
-            }
-            if (how == 1) {
-                return resorted(c / SORTS, c % SORTS);
-            }
-            return how == 2 ? leafMade(c / 3, c % 3) : partMade(c / 3, c % 3);
-        }
-
         private boolean resorted(int node, int sort) {
             int old = base.get(node, 0);
             int second = shape.partAt(node, 1);
@@ -2327,7 +2394,7 @@ public final class BreedingHouse {
                     || wantsTruth(sort, 0) != wantsTruth(old, 0)) {
                 return false;
             }
-            if ((sort == S || sort == E) && !shape.inner[node]
+            if ((sort == CARRIED || sort == EACH) && !shape.inner[node]
                     || sort == FOLD && (shape.inner[node] || second < base.size && shape.folds[second])
                     || old == FOLD && second < base.size && shape.loose[second]) {
                 return false;
@@ -2338,8 +2405,8 @@ public final class BreedingHouse {
             return true;
         }
 
-        private boolean leafMade(int node, int which) {
-            int sort = which == 1 ? X : CONSTANT;
+        private boolean leafFits(int node, int which) {
+            int sort = which == 1 ? INPUT_X : CONSTANT;
             int constant = which == 2 ? 1 : 0;
             int old = base.get(node, 0);
             if (isTruth(old) || old == sort && base.get(node, 1) == constant) {
@@ -2347,38 +2414,42 @@ public final class BreedingHouse {
             }
             part.start(TREE, 0);
             part.append(sort, constant);
-            return grafted(node, part, 0, 1);
+            return toGraft(part, 0, 1);
         }
 
-        private boolean partMade(int node, int k) {
+        private boolean partFits(int node, int k) {
             int sort = base.get(node, 0);
             int at = shape.partAt(node, k);
             if (k >= partsOf(sort) || at >= base.size || wantsTruth(sort, k) != isTruth(sort)
                     || sort == FOLD && k == 1 && shape.loose[at]) {
                 return false;
             }
-            return grafted(node, base, at, shape.endOf(at));
+            return toGraft(base, at, shape.endOf(at));
         }
 
-        /** Nodes of a program come for a node and all that is in it. */
-        private boolean grafted(int node, Program from, int begin, int end) {
+        private boolean nodesFit(int i, int j) {
+            return isTruth(base.get(i, 0)) == isTruth(mate.get(j, 0))
+                    && shape.deep[i] - 1 + mateShape.tall[j] <= MOST_DEPTH
+                    && !(shape.inner[i] && mateShape.folds[j]) && !(mateShape.loose[j] && !shape.inner[i])
+                    && toGraft(mate, j, mateShape.endOf(j));
+        }
+
+        private boolean toGraft(Program from, int begin, int end) {
+            graft = from;
+            graftFrom = begin;
+            graftTo = end;
+            return true;
+        }
+
+        /** What is to be grafted comes for a node and all that is in it; false without room. */
+        private boolean grafted(int node) {
             out.start(TREE, 0);
-            return out.take(base, 0, node) && out.take(from, begin, end)
+            return graft != null && out.take(base, 0, node) && out.take(graft, graftFrom, graftTo)
                     && out.take(base, shape.endOf(node), base.size);
         }
 
-        private boolean codeMade(int c) {
-            if (how == 0) {
-                return base.get(c / 5, 0) == CONSTANT && nudged(c / 5, 1, c % 5);
-            }
-            if (how == 1) {
-                return reinstructed(c / 14, c % 14);
-            }
-            return how == 2 ? leftOut(c / 3, c % 3 + 1) : inserted(c / 5, c % 5);
-        }
-
         private static int family(int sort) {
-            return sort <= N ? 0 : sort <= CODE_AT ? 1 : sort <= CODE_SAME ? 2 : 3;
+            return sort <= ROW_LENGTH ? 0 : sort <= CODE_AT ? 1 : sort <= CODE_SAME ? 2 : 3;
         }
 
         private boolean reinstructed(int i, int sort) {
@@ -2416,7 +2487,7 @@ public final class BreedingHouse {
             if (which == 0) {
                 part.append(CODE_LESS, 0);
             } else {
-                part.append(which < 3 ? CONSTANT : which == 3 ? X : DOUBLE, which < 3 ? 1 : 0);
+                part.append(which < 3 ? CONSTANT : which == 3 ? INPUT_X : DOUBLE, which < 3 ? 1 : 0);
                 part.append(which == 2 ? CODE_MINUS : which == 4 ? CODE_TIMES : CODE_PLUS, 0);
             }
             out.start(CODE, 0);
@@ -2431,26 +2502,25 @@ public final class BreedingHouse {
             return true;
         }
 
-        private boolean machineMade(int c) {
-            int states = base.size;
-            if (how == 0) {
-                return nudged(c / 5, 0, c % 5);
+        private boolean edgeMoved(int edge, int to) {
+            int state = edge / CLASSES;
+            int what = 1 + edge % CLASSES;
+            if (base.get(state, what) == to) {
+                return false;
             }
-            if (how == 1) {
-                int to = c % states;
-                int edge = c / states;
-                out.copy(base);
-                out.store(edge / CLASSES, 1 + edge % CLASSES, to);
-                return base.get(edge / CLASSES, 1 + edge % CLASSES) != to;
+            out.copy(base);
+            out.store(state, what, to);
+            return true;
+        }
+
+        private boolean stateAdded(int edge) {
+            int to = base.get(edge / CLASSES, 1 + edge % CLASSES);
+            out.copy(base);
+            if (!out.take(base, to, to + 1)) {
+                return false;
             }
-            if (how == 2) {
-                int to = base.get(c / CLASSES, 1 + c % CLASSES);
-                out.copy(base);
-                out.take(base, to, to + 1);
-                out.store(c / CLASSES, 1 + c % CLASSES, states);
-                return true;
-            }
-            return stateLeftOut(c + 1);
+            out.store(edge / CLASSES, 1 + edge % CLASSES, base.size);
+            return true;
         }
 
         private boolean stateLeftOut(int gone) {
@@ -2464,68 +2534,42 @@ public final class BreedingHouse {
             return true;
         }
 
-        private boolean netMade(int c) {
-            int comparators = base.lines * (base.lines - 1) / 2;
-            if (how == 1) {
-                out.start(NET, base.lines);
-                return out.take(base, 0, c) && out.take(base, c + 1, base.size);
+        private boolean statesMixed(int mask) {
+            out.start(MACHINE, 0);
+            for (int k = 0; k < base.size; k++) {
+                out.take((mask >> k & 1) == 1 ? mate : base, k, k + 1);
             }
-            if (how == 3) {
-                out.copy(base);
-                swapComparators(c);
-                return !out.alike(base);
-            }
-            if (comparators < 1) {
-                return false;
-            }
-            int place = c / comparators;
-            comparator(c % comparators);
-            out.start(NET, base.lines);
-            out.take(base, 0, place);
-            out.take(part, 0, 1);
-            out.take(base, how == 0 ? place + 1 : place, base.size);
-            return how == 2 || !out.alike(base);
+            return true;
         }
 
-        private void swapComparators(int c) {
-            out.store(c, 0, base.get(c + 1, 0));
-            out.store(c, 1, base.get(c + 1, 1));
-            out.store(c + 1, 0, base.get(c, 0));
-            out.store(c + 1, 1, base.get(c, 1));
-        }
-
-        /** The comparator with a number in the order of i, then j. */
-        private void comparator(int number) {
+        /** The comparator with a number, in the order of i, then j, comes for so many at a place. */
+        private boolean comparatorPut(int place, int number, int gone) {
             int left = number;
             int i = 0;
             while (i < base.lines - 1 && left >= base.lines - 1 - i) {
                 left -= base.lines - 1 - i;
                 i++;
             }
-            part.start(NET, base.lines);
-            part.append(i, i + 1 + left);
-        }
-
-        private boolean pairMade(int c) {
-            if (base.kind == MACHINE) {
-                out.start(MACHINE, 0);
-                for (int k = 0; k < base.size; k++) {
-                    out.take((c + 1 >> k & 1) == 1 ? mate : base, k, k + 1);
-                }
-                return true;
-            }
-            int many = base.kind == TREE ? mate.size : mate.size + 1;
-            if (many < 1) {
+            int j = i + 1 + left;
+            if (gone == 1 && base.get(place, 0) == i && base.get(place, 1) == j) {
                 return false;
             }
-            return base.kind == TREE ? nodesMade(c / many, c % many) : joined(c / many, c % many);
+            out.start(NET, base.lines);
+            return out.take(base, 0, place) && out.append(i, j) && out.take(base, place + gone, base.size);
         }
 
-        private boolean nodesMade(int i, int j) {
-            return isTruth(base.get(i, 0)) == isTruth(mate.get(j, 0))
-                    && shape.deep[i] - 1 + mateShape.tall[j] <= MOST_DEPTH
-                    && !(shape.inner[i] && mateShape.folds[j]) && !(mateShape.loose[j] && !shape.inner[i])
-                    && grafted(i, mate, j, mateShape.endOf(j));
+        private boolean comparatorLeftOut(int c) {
+            out.start(NET, base.lines);
+            return out.take(base, 0, c) && out.take(base, c + 1, base.size);
+        }
+
+        private boolean comparatorsSwapped(int c) {
+            if (base.get(c, 0) == base.get(c + 1, 0) && base.get(c, 1) == base.get(c + 1, 1)) {
+                return false;
+            }
+            out.start(NET, base.lines);
+            return out.take(base, 0, c) && out.take(base, c + 1, c + 2) && out.take(base, c, c + 1)
+                    && out.take(base, c + 2, base.size);
         }
 
         private boolean joined(int i, int j) {
@@ -2534,8 +2578,7 @@ public final class BreedingHouse {
                 return false;
             }
             out.start(base.kind, base.lines);
-            return out.take(base, 0, i) && out.take(mate, j, mate.size)
-                    && (base.kind == CODE || out.size <= MOST_COMPARATORS);
+            return out.take(base, 0, i) && out.take(mate, j, mate.size);
         }
 
         /** A drawn tree comes for a drawn node; out is as p if that isn't sound. */
@@ -2550,7 +2593,8 @@ public final class BreedingHouse {
             }
             ranks.build(context, size, stream.wide(ranks.total(context, size)), part);
             mateShape.ofTree(part);
-            if (shape.deep[node] - 1 + mateShape.tall[0] > MOST_DEPTH || !grafted(node, part, 0, part.size)) {
+            toGraft(part, 0, part.size);
+            if (shape.deep[node] - 1 + mateShape.tall[0] > MOST_DEPTH || !grafted(node)) {
                 out.copy(p);
             }
         }
@@ -2652,7 +2696,7 @@ public final class BreedingHouse {
         }
 
         private boolean is(int node, int v) {
-            return isConstant(node) && tree.get(node, 1) == v;
+            return node < tree.size && tree.get(node, 0) == CONSTANT && tree.get(node, 1) == v;
         }
 
         private boolean safe(int node) {
@@ -2786,7 +2830,7 @@ public final class BreedingHouse {
 
         private boolean emit(int node, int depth) {
             int sort = tree.get(node, 0);
-            if (depth > MOST_DEPTH || sort == S || sort == E || sort == FOLD) {
+            if (depth > MOST_DEPTH || sort == CARRIED || sort == EACH || sort == FOLD) {
                 return false;
             }
             if (sort < LESS) {
@@ -2876,7 +2920,7 @@ public final class BreedingHouse {
             if (height < Shape.needs(sort) || height + Shape.grows(sort) > MOST_HEIGHT || sort >= JUMP) {
                 return false;
             }
-            if (sort <= N) {
+            if (sort <= ROW_LENGTH) {
                 pile[height].start(TREE, 0);
                 pile[height].append(sort, constant);
             } else if (sort <= CODE_SAME) {
