@@ -131,7 +131,7 @@ public final class BreedingHouse {
         return texts.collect(eight);
     }
 
-    public int read(int kind) {
+    public int read(int kind) throws IllegalArgumentException, IllegalStateException {
         if (kind < TREE || kind > NET) {
             throw new IllegalArgumentException("no such kind");
         }
@@ -140,11 +140,11 @@ public final class BreedingHouse {
         return wrong >= 0 ? -1 - wrong : bear(spare, BY_READ, -1, -1, -1, -1, 0L);
     }
 
-    public int printed(int b) {
+    public int printed(int b) throws IndexOutOfBoundsException {
         return texts.write(birthAt(b));
     }
 
-    public int letter(int b, int i) {
+    public int letter(int b, int i) throws IndexOutOfBoundsException {
         int length = texts.write(birthAt(b));
         return i >= 0 && i < length ? texts.written(i) : -1;
     }
@@ -155,7 +155,7 @@ public final class BreedingHouse {
         return bornCount;
     }
 
-    public int birth(int b, int what) {
+    public int birth(int b, int what) throws IndexOutOfBoundsException, IllegalArgumentException {
         Program p = birthAt(b);
         switch (what) {
             case 0:
@@ -181,11 +181,11 @@ public final class BreedingHouse {
         }
     }
 
-    public long seed(int b) {
+    public long seed(int b) throws IndexOutOfBoundsException {
         return birthAt(b).seed;
     }
 
-    public int item(int b, int i, int what) {
+    public int item(int b, int i, int what) throws IndexOutOfBoundsException, IllegalArgumentException {
         Program p = birthAt(b);
         if (i < 0 || i >= p.size) {
             throw new IndexOutOfBoundsException("no such item");
@@ -196,19 +196,19 @@ public final class BreedingHouse {
         return p.get(i, what);
     }
 
-    public boolean same(int a, int b) {
+    public boolean same(int a, int b) throws IndexOutOfBoundsException {
         Program p = birthAt(a);
         return p.alike(birthAt(b));
     }
 
-    public long trees(int size) {
+    public long trees(int size) throws IllegalArgumentException {
         if (size < 1 || size > MOST_ORDERED) {
             throw new IllegalArgumentException("no such size");
         }
         return ranks.total(Ranks.FREE, size);
     }
 
-    public int tree(int size, long place) {
+    public int tree(int size, long place) throws IllegalArgumentException, IllegalStateException {
         if (size < 1 || size > MOST_ORDERED || place < 0 || place >= ranks.total(Ranks.FREE, size)) {
             throw new IllegalArgumentException("no such tree");
         }
@@ -217,7 +217,7 @@ public final class BreedingHouse {
         return bear(spare, BY_ORDER, -1, -1, -1, -1, 0L);
     }
 
-    public long place(int b) {
+    public long place(int b) throws IndexOutOfBoundsException, IllegalArgumentException {
         Program p = birthAt(b);
         if (p.kind != TREE || p.size > MOST_ORDERED) {
             throw new IllegalArgumentException("no tree that is in the order");
@@ -237,7 +237,8 @@ public final class BreedingHouse {
         return length + 1;
     }
 
-    public int add(int x, int y, int z, int want, int weight, boolean hidden) {
+    public int add(int x, int y, int z, int want, int weight, boolean hidden)
+            throws IllegalArgumentException, IllegalStateException {
         if (weight < 1 || weight > 9) {
             throw new IllegalArgumentException("no such weight");
         }
@@ -255,7 +256,7 @@ public final class BreedingHouse {
         return number;
     }
 
-    public int drop(int k) {
+    public int drop(int k) throws IndexOutOfBoundsException {
         needCase(k);
         judge.forget(k);
         return judge.count;
@@ -265,7 +266,7 @@ public final class BreedingHouse {
         return judge.count;
     }
 
-    public int told(int k, int what) {
+    public int told(int k, int what) throws IndexOutOfBoundsException, IllegalArgumentException {
         needCase(k);
         if (what < 0 || what >= CASE_WIDTH) {
             throw new IllegalArgumentException("no such what");
@@ -275,7 +276,7 @@ public final class BreedingHouse {
 
     // ---- running and judging
 
-    public int run(int b, int k) {
+    public int run(int b, int k) throws IndexOutOfBoundsException {
         Program p = birthAt(b);
         needCase(k);
         judge.runner.load(p);
@@ -283,7 +284,7 @@ public final class BreedingHouse {
         return remembered();
     }
 
-    public int ask(int b, int x, int y, int z) {
+    public int ask(int b, int x, int y, int z) throws IndexOutOfBoundsException {
         judge.runner.load(birthAt(b));
         draft[0] = x;
         draft[1] = y;
@@ -300,21 +301,21 @@ public final class BreedingHouse {
         return lastSteps;
     }
 
-    public int error(int b, int k) {
+    public int error(int b, int k) throws IndexOutOfBoundsException {
         Program p = birthAt(b);
         needCase(k);
         judge.runner.load(p);
         return judge.errorOn(k);
     }
 
-    public long score(int b, boolean hidden, int part) {
+    public long score(int b, boolean hidden, int part) throws IndexOutOfBoundsException, IllegalArgumentException {
         Program p = birthAt(b);
         needPart(part);
         judge.lower(judge.cost(p, hidden), judge.weight(hidden));
         return judge.part(part);
     }
 
-    public long overfit(int b, int part) {
+    public long overfit(int b, int part) throws IndexOutOfBoundsException, IllegalArgumentException {
         Program p = birthAt(b);
         needPart(part);
         long seen = judge.weight(false);
@@ -323,7 +324,7 @@ public final class BreedingHouse {
         return judge.part(part);
     }
 
-    public int hits(int b, boolean hidden) {
+    public int hits(int b, boolean hidden) throws IndexOutOfBoundsException {
         judge.runner.load(birthAt(b));
         int hits = 0;
         for (int k = 0; k < judge.count; k++) {
@@ -334,7 +335,7 @@ public final class BreedingHouse {
         return hits;
     }
 
-    public int compare(int a, int b) {
+    public int compare(int a, int b) throws IndexOutOfBoundsException {
         Program p = birthAt(a);
         Program q = birthAt(b);
         int order = Long.compare(judge.cost(p, false), judge.cost(q, false));
@@ -344,7 +345,7 @@ public final class BreedingHouse {
         return order != 0 ? order : Integer.compare(a, b);
     }
 
-    public int set(int what, int v) {
+    public int set(int what, int v) throws IllegalArgumentException {
         if (what < 0 || what >= settings.length || v < SET_LEAST[what] || v > SET_MOST[what]) {
             throw new IllegalArgumentException("no such setting");
         }
@@ -356,14 +357,15 @@ public final class BreedingHouse {
 
     // ---- changes
 
-    public int edits(int b, int how) {
+    public int edits(int b, int how) throws IndexOutOfBoundsException, IllegalArgumentException {
         Program p = birthAt(b);
         needHow(how);
         changer.begin(p, null, how);
         return changer.count();
     }
 
-    public int edit(int b, int how, int i) {
+    public int edit(int b, int how, int i)
+            throws IndexOutOfBoundsException, IllegalArgumentException, IllegalStateException {
         Program p = birthAt(b);
         needHow(how);
         changer.begin(p, null, how);
@@ -374,7 +376,8 @@ public final class BreedingHouse {
         return bear(changer.out, BY_CHANGE, b, -1, how, i, 0L);
     }
 
-    public int change(int b, int how, long seed) {
+    public int change(int b, int how, long seed)
+            throws IndexOutOfBoundsException, IllegalArgumentException, IllegalStateException {
         Program p = birthAt(b);
         if (how < 0 || how > REGROWTH || how == REGROWTH && p.kind != TREE) {
             throw new IllegalArgumentException("no such how");
@@ -383,13 +386,14 @@ public final class BreedingHouse {
         return bred(b, -1, how, seed);
     }
 
-    public int pairs(int a, int b) {
+    public int pairs(int a, int b) throws IndexOutOfBoundsException {
         Program p = birthAt(a);
         changer.begin(p, birthAt(b), 0);
         return changer.count();
     }
 
-    public int cross(int a, int b, long seed) {
+    public int cross(int a, int b, long seed)
+            throws IndexOutOfBoundsException, IllegalArgumentException, IllegalStateException {
         Program p = birthAt(a);
         if (p.kind != birthAt(b).kind) {
             throw new IllegalArgumentException("two kinds");
@@ -400,7 +404,8 @@ public final class BreedingHouse {
 
     // ---- islands
 
-    public int populate(int island, int kind, int n, int size, long seed) {
+    public int populate(int island, int kind, int n, int size, long seed)
+            throws IndexOutOfBoundsException, IllegalArgumentException, IllegalStateException {
         Island home = islandAt(island);
         int least = kind == NET ? 2 : 1;
         int most = kind == MACHINE ? MOST_STATES : kind == NET ? 8 : 9;
@@ -418,15 +423,16 @@ public final class BreedingHouse {
         return firstBirth;
     }
 
-    public int members(int island) {
+    public int members(int island) throws IndexOutOfBoundsException {
         return islandAt(island).count;
     }
 
-    public int member(int island, int place) {
+    public int member(int island, int place) throws IndexOutOfBoundsException {
         return memberAt(islandAt(island), place);
     }
 
-    public int breed(int island, int generations) {
+    public int breed(int island, int generations)
+            throws IndexOutOfBoundsException, IllegalArgumentException, IllegalStateException {
         Island home = islandAt(island);
         if (generations < 1 || generations > 20) {
             throw new IllegalArgumentException("no such number of generations");
@@ -443,7 +449,7 @@ public final class BreedingHouse {
         return home.birthOf[home.bestPlace()];
     }
 
-    public boolean move(int from, int to) {
+    public boolean move(int from, int to) throws IndexOutOfBoundsException {
         Island source = islandAt(from);
         Island target = islandAt(to);
         if (from == to || source.count == 0 || target.count == 0
@@ -456,7 +462,7 @@ public final class BreedingHouse {
         return true;
     }
 
-    public int best(int island) {
+    public int best(int island) throws IndexOutOfBoundsException, IllegalStateException {
         Island home = islandAt(island);
         if (home.count == 0) {
             throw new IllegalStateException("no members");
@@ -465,14 +471,15 @@ public final class BreedingHouse {
         return home.birthOf[home.bestPlace()];
     }
 
-    public int front(int island, int k) {
+    public int front(int island, int k) throws IndexOutOfBoundsException {
         Island home = islandAt(island);
         home.look(born, judge);
         int place = k < 0 ? -1 : home.frontPlace(k);
         return place < 0 ? -1 : home.birthOf[place];
     }
 
-    public int odds(int island, int place, int part) {
+    public int odds(int island, int place, int part)
+            throws IndexOutOfBoundsException, IllegalArgumentException, IllegalStateException {
         Island home = islandAt(island);
         memberAt(home, place);
         needPart(part);
@@ -484,12 +491,12 @@ public final class BreedingHouse {
         return (int) judge.part(part);
     }
 
-    public long distance(int a, int b) {
+    public long distance(int a, int b) throws IndexOutOfBoundsException {
         Program p = birthAt(a);
         return judge.apart(p, birthAt(b));
     }
 
-    public long novelty(int island, int place) {
+    public long novelty(int island, int place) throws IndexOutOfBoundsException {
         Island home = islandAt(island);
         Program p = birthAt(memberAt(home, place));
         long least = FARTHEST;
@@ -508,7 +515,7 @@ public final class BreedingHouse {
 
     // ---- pedigrees
 
-    public int line(int b) {
+    public int line(int b) throws IndexOutOfBoundsException {
         birthAt(b);
         Arrays.fill(marks, 0);
         markLine(b, 1);
@@ -519,7 +526,7 @@ public final class BreedingHouse {
         return many;
     }
 
-    public int forebear(int a, int b) {
+    public int forebear(int a, int b) throws IndexOutOfBoundsException {
         birthAt(a);
         birthAt(b);
         Arrays.fill(marks, 0);
@@ -533,7 +540,7 @@ public final class BreedingHouse {
         return -1;
     }
 
-    public long gain(int b, int part) {
+    public long gain(int b, int part) throws IndexOutOfBoundsException, IllegalArgumentException {
         Program p = birthAt(b);
         needPart(part);
         if (p.first < 0) {
@@ -544,7 +551,7 @@ public final class BreedingHouse {
         return judge.part(part);
     }
 
-    public boolean replay(int b) {
+    public boolean replay(int b) throws IndexOutOfBoundsException, IllegalArgumentException {
         Program p = birthAt(b);
         if (p.way != BY_CHANGE && p.way != BY_CROSS) {
             throw new IllegalArgumentException("of another way");
@@ -566,7 +573,7 @@ public final class BreedingHouse {
 
     // ---- understanding
 
-    public int search(int size) {
+    public int search(int size) throws IllegalArgumentException, IllegalStateException {
         if (size < 1 || size > 5) {
             throw new IllegalArgumentException("no such size");
         }
@@ -579,7 +586,7 @@ public final class BreedingHouse {
         return bear(spare, BY_ORDER, -1, -1, -1, -1, 0L);
     }
 
-    public int simple(int b) {
+    public int simple(int b) throws IndexOutOfBoundsException, IllegalArgumentException, IllegalStateException {
         Program p = birthAt(b);
         if (p.kind != TREE) {
             throw new IllegalArgumentException("no tree");
@@ -601,7 +608,7 @@ public final class BreedingHouse {
         return what == 0 ? rules.nodes[k] : rules.numbers[k];
     }
 
-    public boolean proves(int a, int b) {
+    public boolean proves(int a, int b) throws IndexOutOfBoundsException {
         Program p = birthAt(a);
         Program q = birthAt(b);
         if (p.kind != TREE || q.kind != TREE) {
@@ -611,7 +618,7 @@ public final class BreedingHouse {
         return rules.goOver(spare) && spare.alike(q);
     }
 
-    public int equal(int a, int b) {
+    public int equal(int a, int b) throws IndexOutOfBoundsException {
         Program p = birthAt(a);
         Program q = birthAt(b);
         if (p.kind == MACHINE && q.kind == MACHINE) {
@@ -630,14 +637,14 @@ public final class BreedingHouse {
         return shownUnlike(p, q) ? 0 : 2;
     }
 
-    public int witness(int what) {
+    public int witness(int what) throws IllegalArgumentException {
         if (what < 0 || what >= unlikeRow.length) {
             throw new IllegalArgumentException("no such what");
         }
         return unlikeRow[what];
     }
 
-    public int minimal(int b) {
+    public int minimal(int b) throws IndexOutOfBoundsException, IllegalStateException {
         Program p = birthAt(b);
         needRoom(1);
         int how = p.kind == CODE ? 2 : p.kind == NET ? 1 : 3;
@@ -650,7 +657,7 @@ public final class BreedingHouse {
         return bear(spare, BY_MINIMAL, b, -1, -1, -1, 0L);
     }
 
-    public int robust(int b, int how, int what) {
+    public int robust(int b, int how, int what) throws IndexOutOfBoundsException, IllegalArgumentException {
         Program p = birthAt(b);
         if (how < 0 || how >= REGROWTH || what < 0 || what > 2) {
             throw new IllegalArgumentException("no such how or what");
@@ -666,7 +673,8 @@ public final class BreedingHouse {
         return many;
     }
 
-    public int compile(int b, int kind) {
+    public int compile(int b, int kind)
+            throws IndexOutOfBoundsException, IllegalArgumentException, IllegalStateException {
         Program p = birthAt(b);
         if (!(p.kind == TREE && kind == CODE) && !(p.kind == CODE && kind == TREE)) {
             throw new IllegalArgumentException("no such turn");
@@ -676,7 +684,7 @@ public final class BreedingHouse {
         return can ? bear(spare, BY_TURN, b, -1, -1, -1, 0L) : -1;
     }
 
-    public int least(int b) {
+    public int least(int b) throws IndexOutOfBoundsException, IllegalArgumentException, IllegalStateException {
         Program p = birthAt(b);
         if (p.kind != MACHINE) {
             throw new IllegalArgumentException("no machine");
@@ -686,18 +694,18 @@ public final class BreedingHouse {
         return bear(spare, BY_TURN, b, -1, -1, -1, 0L);
     }
 
-    public int clean(int b) {
+    public int clean(int b) throws IndexOutOfBoundsException, IllegalArgumentException, IllegalStateException {
         Program p = netAt(b);
         needRoom(1);
         turner.tidy(p, spare);
         return bear(spare, BY_TURN, b, -1, -1, -1, 0L);
     }
 
-    public int unsorted(int b) {
+    public int unsorted(int b) throws IndexOutOfBoundsException, IllegalArgumentException {
         return turner.firstUnsorted(netAt(b));
     }
 
-    public int layers(int b) {
+    public int layers(int b) throws IndexOutOfBoundsException, IllegalArgumentException {
         return turner.layersOf(netAt(b));
     }
 
