@@ -58,6 +58,21 @@ public final class JudgingTest {
         C.fails("ask of none", Check.INDEX, () -> h.ask(-1, 0, 0, 0));
         C.is("value is of the latest", h.value(), 0);
         C.is("used is of the latest", h.used(), 16);
+        deep(h);
+    }
+
+    /** Trees that are 12 deep in their first, second and third parts. */
+    private static void deep(BreedingHouse h) {
+        tree(h, Check.repeat("(~ ", 11) + "x" + Check.repeat(")", 11), 7, 0, 0, 0, -7, 12);
+        tree(h, Check.repeat("(+ 1 ", 11) + "x" + Check.repeat(")", 11), 7, 0, 0, 0, 18, 23);
+        tree(h, Check.repeat("(+ ", 11) + "x" + Check.repeat(" 2)", 11), 7, 0, 0, 0, 29, 23);
+        tree(h, Check.repeat("(? (= 1 2) 3 ", 10) + "(~ x)" + Check.repeat(")", 10), 7, 0, 0, 0, -7, 42);
+        tree(h, Check.repeat("(? (= 1 1) ", 10) + "(~ x)" + Check.repeat(" 3)", 10), 7, 0, 0, 0, -7, 42);
+        tree(h, "(? " + Check.repeat("(! ", 9) + "(= 1 1)" + Check.repeat(")", 9) + " 3 x)", 7, 0, 0, 0, 7, 14);
+        tree(h, "(? " + Check.repeat("(& (= 1 1) ", 9) + "(= 1 1)" + Check.repeat(")", 9) + " x 3)", 7, 0, 0, 0, 7, 41);
+        tree(h, "(? " + Check.repeat("(| (= 1 2) ", 9) + "(= 1 1)" + Check.repeat(")", 9) + " x 3)", 7, 0, 0, 0, 7, 41);
+        tree(h, Check.repeat("(@ ", 9) + "x" + Check.repeat(" s)", 9), 7, 0, 0, 0, 7, 46);
+        tree(h, "(@ 5 " + Check.repeat("(- 1 ", 10) + "e" + Check.repeat(")", 10) + ")", 7, 0, 0, 0, 1, 86);
     }
 
     private static void code(BreedingHouse h, String text, int x, int y, int z, int... due) {

@@ -47,6 +47,13 @@ public final class UnderstandingTest {
         C.is("of the row", Check.print(g, g.search(5)), "(# 1)");
         g.add(0, 0, 0, 0, 1, false);
         C.is("a fault is no answer", g.search(2), -1);
+        BreedingHouse row = new BreedingHouse();
+        Check.put(row, 17, 8);
+        row.add(0, 0, 0, 17, 1, false);
+        C.is("the first of the row", Check.print(row, row.search(2)), "(# 0)");
+        Check.put(row, 6, 34);
+        row.add(1, 0, 0, 34, 1, false);
+        C.is("by x", Check.print(row, row.search(2)), "(# x)");
         BreedingHouse q = new BreedingHouse();
         q.add(Integer.MIN_VALUE, -1, 0, Integer.MIN_VALUE, 1, false);
         q.add(7, 2, 0, 3, 1, false);
