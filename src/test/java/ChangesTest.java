@@ -249,6 +249,23 @@ public final class ChangesTest {
             }
         }
         C.is("that was tried", kept > 0, true);
+        justDeepEnough();
+    }
+
+    private static void justDeepEnough() {
+        BreedingHouse h = new BreedingHouse();
+        int deep = Check.tree(h, Check.repeat("(~ ", 11) + "x" + Check.repeat(")", 11));
+        int tried = 0;
+        for (long seed = 0; seed < 300; seed++) {
+            Draws draws = new Draws(seed);
+            if (draws.next() % 12 == 10 && draws.next() % 4 == 1) {
+                String due = Check.print(h, h.tree(2, draws.wide(h.trees(2))));
+                C.is("12 deep is fine", Check.print(h, h.change(deep, 4, seed)),
+                        Check.repeat("(~ ", 10) + due + Check.repeat(")", 10));
+                tried++;
+            }
+        }
+        C.is("that was tried", tried > 0, true);
     }
 
     private static void pairsAre(int kind, String a, String b, int due) {

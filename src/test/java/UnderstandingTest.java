@@ -59,6 +59,12 @@ public final class UnderstandingTest {
         q.add(7, 2, 0, 3, 1, false);
         q.add(-7, 2, 0, -3, 1, false);
         C.is("towards 0", Check.print(q, q.search(3)), "(/ x y)");
+        BreedingHouse z = new BreedingHouse();
+        z.add(7, 4, 0, 3, 1, false);
+        z.add(5, 0, 0, 0, 1, false);
+        z.add(9, 5, 0, 4, 1, false);
+        C.is("a rest of nothing is no 0", z.search(4), -1);
+        C.is("nor a quotient", Check.print(z, z.search(5)), "(- y (/ x 6))");
         C.fails("size 0", Check.ARGUMENT, () -> h.search(0));
         C.fails("size 6", Check.ARGUMENT, () -> h.search(6));
         Check.fill(h, 600);
@@ -150,6 +156,12 @@ public final class UnderstandingTest {
         rule("(? (< x x) z n)", 5, "n");
         rule("(? (< (/ x y) (/ x y)) z n)", -1, "(? (< (/ x y) (/ x y)) z n)");
         rule("(? (! (< x y)) z n)", 6, "(? (< x y) n z)");
+        rule("(? (! (< 1 2)) x y)", 3, "y");
+        rule("(? (! (= x x)) y z)", 5, "z");
+        rule("(? (& (< 1 2) (= x x)) y z)", -1, "(? (& (< 1 2) (= x x)) y z)");
+        rule("(? (| (= x x) (< 1 2)) y z)", -1, "(? (| (= x x) (< 1 2)) y z)");
+        rule("(? (< 1 x) y z)", -1, "(? (< 1 x) y z)");
+        rule("(? (= x 1) y z)", -1, "(? (= x 1) y z)");
         rule("(* 0 x)", 7, "0");
         rule("(* x 0)", 7, "0");
         rule("(* 0 (@ x s))", -1, "(* 0 (@ x s))");
