@@ -62,6 +62,8 @@ public final class ChangesTest {
         edits(1, "x ~ ~", 2, "x ~/x/x ~");
         edits(1, "x 0 < b2 1 j1 7", 2, "x b2 1 j1 7/x 0 < b0 7");
         many(1, "x 0 < b2 1 j1 7", 3, 25);
+        edits(1, "x y b1 ~ ~ ~ ~", 2, "x ~ ~ ~ ~/x ~ ~ ~/x y b0 ~ ~ ~/x y b1 ~ ~ ~/x y b1 ~ ~/x y b1 ~"
+                + "/x y b1 ~ ~ ~/x y b1 ~ ~/x y b1 ~ ~ ~");
         edits(1, "x", 3, "x ~/x 1 +/x 1 -/x x +/x d *");
         many(1, "x" + Check.repeat(" ~", 59), 3, 0);
         many(1, "x" + Check.repeat(" ~", 58), 3, 59);

@@ -292,6 +292,12 @@ public final class IslandsTest {
         C.fails("no island", Check.INDEX, () -> h.move(0, 4));
         C.fails("no island", Check.INDEX, () -> h.move(-1, 0));
         worstTwice();
+        BreedingHouse one = new BreedingHouse();
+        one.populate(0, 3, 3, 4, 1);
+        one.populate(0, 0, 1, 4, 1);
+        one.populate(1, 0, 1, 4, 1);
+        C.is("those of now count, not those of once", one.move(0, 1), true);
+        C.is("its only place", one.member(1, 0), one.member(0, 0));
     }
 
     private static void worstTwice() {

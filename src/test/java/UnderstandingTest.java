@@ -408,6 +408,15 @@ public final class UnderstandingTest {
         }
         compiled(0, right, Check.repeat("x ", 8) + "+" + Check.repeat(" +", 6));
         compiled(0, "(+ x " + right + ")", "none");
+        compiled(0, Check.repeat("(? (= 1 2) 3 ", 9) + "(~ (~ x))" + Check.repeat(")", 9),
+                "1 2 = b2 3 j51 1 2 = b2 3 j45 1 2 = b2 3 j39 1 2 = b2 3 j33 1 2 = b2 3 j27 1 2 = b2 3 j21 1 2 = b2 3 j15 "
+                + "1 2 = b2 3 j9 1 2 = b2 3 j3 x ~ ~");
+        compiled(0, "(? " + Check.repeat("(& (= 1 1) ", 8) + "(= (~ 1) 1)" + Check.repeat(")", 8) + " x 3)",
+                "1 1 = b47 1 1 = b41 1 1 = b35 1 1 = b29 1 1 = b23 1 1 = b17 1 1 = b11 1 1 = b5 1 ~ 1 ="
+                + Check.repeat(" j1 0", 8) + " b2 x j1 3");
+        compiled(0, "(? " + Check.repeat("(| (= 1 1) ", 8) + "(= (~ 1) 1)" + Check.repeat(")", 8) + " x 3)",
+                "1 1 = b2 1 j46 1 1 = b2 1 j40 1 1 = b2 1 j34 1 1 = b2 1 j28 1 1 = b2 1 j22 1 1 = b2 1 j16 1 1 = b2 1 j10 "
+                + "1 1 = b2 1 j4 1 ~ 1 = b2 x j1 3");
         String fits = "(~ " + conditions(4) + ")";
         compiled(0, conditions(6), "none");
         BreedingHouse h = new BreedingHouse();
