@@ -487,7 +487,7 @@ public final class BreedingHouse {
         if (home.seen > 6) {
             throw new IllegalStateException("too many seen cases");
         }
-        judge.lower(home.wins((1 << home.count) - 1, (1 << home.seen) - 1, place), Island.orders(home.seen));
+        judge.lower(home.ordersFor(place), Island.orders(home.seen));
         return (int) judge.part(part);
     }
 
@@ -1627,8 +1627,13 @@ public final class BreedingHouse {
             return kept;
         }
 
-        /** In how many orders of the cases that are left a place is chosen; each level has one case fewer. */
-        int wins(int mask, int cases, int place) {
+        /** In how many orders of the seen cases, of which there are at most six, a place is chosen. */
+        int ordersFor(int place) {
+            return wins((1 << count) - 1, (1 << seen) - 1, place);
+        }
+
+        /** The same for the members and cases that are left; each level has one case fewer. */
+        private int wins(int mask, int cases, int place) {
             if ((mask >> place & 1) == 0) {
                 return 0;
             }
