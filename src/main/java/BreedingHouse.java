@@ -1021,6 +1021,17 @@ public final class BreedingHouse {
             }
         }
 
+        /** Whether a tree has, from one node up to another, none that can come to a fault, and no fold. */
+        boolean safe(int begin, int end) {
+            for (int k = begin; k < end; k++) {
+                int sort = get(k, 0);
+                if (sort == OVER || sort == REST || sort == AT || sort == FOLD) {
+                    return false;
+                }
+            }
+            return true;
+        }
+
         boolean alike(Program q) {
             if (kind != q.kind || lines != q.lines || size != q.size) {
                 return false;
@@ -2713,13 +2724,7 @@ public final class BreedingHouse {
         }
 
         private boolean safe(int node) {
-            for (int k = node; k < shape.endOf(node); k++) {
-                int sort = tree.get(k, 0);
-                if (sort == OVER || sort == REST || sort == AT || sort == FOLD) {
-                    return false;
-                }
-            }
-            return true;
+            return tree.safe(node, shape.endOf(node));
         }
 
         private boolean alike(int a, int b) {
@@ -2947,7 +2952,8 @@ public final class BreedingHouse {
                 pile[height - many].copy(scratch);
             } else if (sort == DOUBLE) {
                 pile[height].copy(pile[height - 1]);
-            } else if (!safe(pile[height - 1]) && (sort == TAKE || !safe(pile[height - 2]))) {
+            } else if (!pile[height - 1].safe(0, pile[height - 1].size)
+                    && (sort == TAKE || !pile[height - 2].safe(0, pile[height - 2].size))) {
                 return false;
             } else if (sort == SWAP) {
                 Program upper = pile[height - 1];
@@ -2965,16 +2971,6 @@ public final class BreedingHouse {
             }
             return target.append(IF, 0) && target.take(from, 0, from.size)
                     && target.append(CONSTANT, 1) && target.append(CONSTANT, 0);
-        }
-
-        private static boolean safe(Program p) {
-            for (int k = 0; k < p.size; k++) {
-                int sort = p.get(k, 0);
-                if (sort == OVER || sort == REST || sort == AT || sort == FOLD) {
-                    return false;
-                }
-            }
-            return true;
         }
 
         /** The machine with the least states that does the same. */

@@ -142,24 +142,6 @@ public final class ChangesTest {
         C.fails("no room for a cross", Check.STATE, () -> h.cross(b, b, 0));
     }
 
-    private static final class Draws {
-        private long state;
-
-        Draws(long seed) {
-            state = seed;
-        }
-
-        long next() {
-            state = state * 6364136223846793005L + 1442695040888963407L;
-            return state >>> 33;
-        }
-
-        long wide(long n) {
-            long a = next();
-            return (2147483648L * a + next()) % n;
-        }
-    }
-
     private static void changes() {
         BreedingHouse h = new BreedingHouse();
         String[] texts = {"(? (< x 3) (@ 1 (+ s e)) (~ y))", "x 3 < b4 y 4 * j1 7", "1:0120;2:1111;3:2010", "4:01,12,23"};
