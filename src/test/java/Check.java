@@ -5,6 +5,13 @@ final class Check {
     static final Class<? extends RuntimeException> STATE = IllegalStateException.class;
 
     private int wrong = 0;
+    private String sentence = "";
+
+    /** What the answers that follow are due by: words of the document, which must stand in that part of it. */
+    void about(String part, String words) {
+        sentence = "[" + part + ": " + words + "] ";
+        is("the document has these words", Document.says(part, words), true);
+    }
 
     static void type(BreedingHouse house, String text) {
         for (int from = 0; from < text.length(); from += 8) {
@@ -80,7 +87,7 @@ final class Check {
     void is(String what, long got, long want) {
         if (got != want) {
             wrong++;
-            System.out.println(what + " answered " + got + ", due is " + want);
+            System.out.println(sentence + what + " answered " + got + ", due is " + want);
         }
     }
 
@@ -91,7 +98,7 @@ final class Check {
     void is(String what, String got, String want) {
         if (!got.equals(want)) {
             wrong++;
-            System.out.println(what + " answered " + got + ", due is " + want);
+            System.out.println(sentence + what + " answered " + got + ", due is " + want);
         }
     }
 
@@ -99,11 +106,11 @@ final class Check {
         try {
             call.run();
             wrong++;
-            System.out.println(what + " threw nothing, due is " + due.getName());
+            System.out.println(sentence + what + " threw nothing, due is " + due.getName());
         } catch (RuntimeException e) {
             if (e.getClass() != due) {
                 wrong++;
-                System.out.println(what + " threw " + e + ", due is " + due.getName());
+                System.out.println(sentence + what + " threw " + e + ", due is " + due.getName());
             }
         }
     }
