@@ -33,6 +33,24 @@ final class ByHand {
         return front;
     }
 
+    /** The front as Term 7 tells it, by score() and birth(). */
+    static List<Integer> dueFront(BreedingHouse h, int island) {
+        List<Integer> due = new ArrayList<>();
+        List<Integer> members = members(h, island);
+        for (int b : members) {
+            boolean in = true;
+            for (int c : members) {
+                long score = h.score(c, false, 0) * h.score(b, false, 1) - h.score(b, false, 0) * h.score(c, false, 1);
+                int size = h.birth(c, 1) - h.birth(b, 1);
+                in = in && !(score <= 0 && size <= 0 && (score < 0 || size < 0));
+            }
+            if (in) {
+                due.add(b);
+            }
+        }
+        return due;
+    }
+
     /** The members that come of these, whose front is known. */
     List<Integer> generation(List<Integer> from, List<Integer> itsFront) {
         members = from;

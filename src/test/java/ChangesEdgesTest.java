@@ -20,6 +20,7 @@ public final class ChangesEdgesTest {
         pushes();
         instructionSorts();
         leftOut();
+        jumpLeftOut();
         comeIn();
         codeIsFull();
         pileIsFull();
@@ -36,6 +37,7 @@ public final class ChangesEdgesTest {
         pairsOfCode();
         pairsOfMachines();
         pairsOfNets();
+        pairsByTurns();
         noPairs();
         anotherHow();
         anotherHowOfEdit();
@@ -134,6 +136,9 @@ public final class ChangesEdgesTest {
         wrong("x b2 1 j2 2 3 +", 12);
         wrong("x b3 1 2 j1 3", 9);
         wrong("x y b1 o", 7);
+        // A place is reached with height 0, then with 1.
+        wrong("x b1 1 2", 5);
+        wrong("x b2 1 j1 2 +", 12);
     }
 
     private static void atTheEnd() {
@@ -149,46 +154,38 @@ public final class ChangesEdgesTest {
         wrong("x y z b1 +", 6);
     }
 
-    private static void edits(int kind, String text, int how, String due) {
-        BreedingHouse h = new BreedingHouse();
-        int b = Check.read(h, kind, text);
-        C.is("edits " + how + " of " + text, Check.edits(h, b, how), due);
-    }
-
-    private static void many(int kind, String text, int how, int due) {
-        BreedingHouse h = new BreedingHouse();
-        C.is("edits " + how + " of " + text, h.edits(Check.read(h, kind, text), how), due);
-    }
-
-    private static final String[][] NEXT = {{"99", "98/89/-99"}, {"98", "99/97/88/-98"}, {"90", "91/89/80/-90"}, {"89", "90/88/99/79/-89"},
-        {"0", "1/-1/10/-10"}, {"1", "2/0/11/-9/-1"}, {"5", "6/4/15/-5/-5"}, {"-1", "0/-2/9/-11/1"}, {"-89", "-88/-90/-79/-99/89"},
+    private static final String[][] NEXT = {{"99", "98/89/-99"}, {"98", "99/97/88/-98"}, {"90", "91/89/80/-90"}, {"89",
+            "90/88/99/79/-89"},
+        {"0", "1/-1/10/-10"}, {"1", "2/0/11/-9/-1"}, {"5", "6/4/15/-5/-5"}, {"-1", "0/-2/9/-11/1"}, {"-89",
+        "-88/-90/-79/-99/89"},
         {"-90", "-89/-91/-80/90"}, {"-98", "-97/-99/-88/98"}, {"-99", "-98/-89/99"}};
 
     private static void constants() {
         C.about("Term 6", "1 more, 1 less, 10 more, 10 less, less it (within -99 .. 99, another one)");
         for (String[] one : NEXT) {
-            edits(0, one[0], 0, one[1]);
+            C.editsAre(0, one[0], 0, one[1]);
         }
-        edits(0, "x", 0, "");
-        edits(0, "(+ 99 0)", 0, "(+ 98 0)/(+ 89 0)/(+ -99 0)/(+ 99 1)/(+ 99 -1)/(+ 99 10)/(+ 99 -10)");
+        C.editsAre(0, "x", 0, "");
+        C.editsAre(0, "(+ 99 0)", 0, "(+ 98 0)/(+ 89 0)/(+ -99 0)/(+ 99 1)/(+ 99 -1)/(+ 99 10)/(+ 99 -10)");
         C.about("Term 6", "(those that come to the same count each)");
-        many(0, "(+ 5 5)", 0, 10);
-        edits(0, "(~ (~ x))", 3, "(~ x)/(~ x)");
+        C.editsMany(0, "(+ 5 5)", 0, 10);
+        C.editsAre(0, "(~ (~ x))", 3, "(~ x)/(~ x)");
     }
 
     private static void leaves() {
         C.about("Term 6", "a node without parts: CONSTANT 1, unless it is a CONSTANT, or 1 .. 6");
-        edits(0, "x", 1, "1/y/z/n");
-        edits(0, "n", 1, "1/x/y/z");
-        edits(0, "1", 1, "x/y/z/n");
-        edits(0, "0", 1, "x/y/z/n");
-        edits(0, "(@ 0 e)", 1, "(@ x e)/(@ y e)/(@ z e)/(@ n e)/(@ 0 1)/(@ 0 x)/(@ 0 y)/(@ 0 z)/(@ 0 n)/(@ 0 s)");
-        edits(0, "(~ x)", 1, "(# x)/(~ 1)/(~ y)/(~ z)/(~ n)");
-        edits(0, "(# 5)", 1, "(~ 5)/(# x)/(# y)/(# z)/(# n)");
+        C.editsAre(0, "x", 1, "1/y/z/n");
+        C.editsAre(0, "n", 1, "1/x/y/z");
+        C.editsAre(0, "1", 1, "x/y/z/n");
+        C.editsAre(0, "0", 1, "x/y/z/n");
+        C.editsAre(0, "(@ 0 e)", 1, "(@ x e)/(@ y e)/(@ z e)/(@ n e)/(@ 0 1)/(@ 0 x)/(@ 0 y)/(@ 0 z)/(@ 0 n)/(@ 0 s)");
+        C.editsAre(0, "(~ x)", 1, "(# x)/(~ 1)/(~ y)/(~ z)/(~ n)");
+        C.editsAre(0, "(# 5)", 1, "(~ 5)/(# x)/(# y)/(# z)/(# n)");
     }
 
     private static void twoParts() {
-        C.about("Term 6", "of each node another SORT (rising) of the same type with as many parts of the same types (@ among + .. %");
+        C.about("Term 6", "of each node another SORT (rising) of the same type with as many parts of the same types "
+                + "(@ among + .. %");
         BreedingHouse h = new BreedingHouse();
         String[] signs = {"+", "-", "*", "/", "%", "@"};
         for (int own = 0; own < 6; own++) {
@@ -201,67 +198,99 @@ public final class ChangesEdgesTest {
                 }
             }
         }
-        many(0, "(? (< x y) 1 2)", 1, 1 + 4 + 4 + 4 + 4);
-        many(0, "(? (= x y) 1 2)", 1, 1 + 4 + 4 + 4 + 4);
-        many(0, "(? (& (< x y) (= x y)) 1 2)", 1, 1 + 1 + 8 + 1 + 8 + 8);
-        many(0, "(? (! (< x y)) 1 2)", 1, 1 + 8 + 8);
+        C.editsMany(0, "(? (< x y) 1 2)", 1, 1 + 4 + 4 + 4 + 4);
+        C.editsMany(0, "(? (= x y) 1 2)", 1, 1 + 4 + 4 + 4 + 4);
+        C.editsMany(0, "(? (& (< x y) (= x y)) 1 2)", 1, 1 + 1 + 8 + 1 + 8 + 8);
+        C.editsMany(0, "(? (! (< x y)) 1 2)", 1, 1 + 8 + 8);
     }
 
     private static void folds() {
         C.about("Term 2", "no FOLD stands in the second part of one");
-        many(0, "(@ 1 (+ s 2))", 1, 4 + 4 + 6 + 6);
-        many(0, "(@ 1 (+ z 2))", 1, 5 + 4 + 4 + 6 + 6);
-        many(0, "(+ 1 (@ 2 s))", 1, 4 + 4 + 4 + 6);
-        many(0, "(+ (@ 2 s) 1)", 1, 5 + 4 + 6 + 4);
-        many(0, "(+ 1 (~ (@ 2 3)))", 1, 4 + 4 + 1 + 5 + 4 + 6);
+        C.editsMany(0, "(@ 1 (+ s 2))", 1, 4 + 4 + 6 + 6);
+        C.editsMany(0, "(@ 1 (+ z 2))", 1, 5 + 4 + 4 + 6 + 6);
+        C.editsMany(0, "(+ 1 (@ 2 s))", 1, 4 + 4 + 4 + 6);
+        C.editsMany(0, "(+ (@ 2 s) 1)", 1, 5 + 4 + 6 + 4);
+        C.editsMany(0, "(+ 1 (~ (@ 2 3)))", 1, 4 + 4 + 1 + 5 + 4 + 6);
         C.about("Term 2", "s and e stand in second parts of FOLDS alone");
-        edits(0, "(@ x (~ s))", 3, "x/(@ x s)");
-        edits(0, "(@ x (~ e))", 3, "x/(@ x e)");
-        edits(0, "(@ x (~ y))", 3, "x/(~ y)/(@ x y)");
-        edits(0, "(@ (@ x s) (~ y))", 3, "(@ x s)/(~ y)/(@ x (~ y))/(@ (@ x s) y)");
+        for (String s : new String[] {"s", "e"}) {
+            String[] seconds = {"(+ " + s + " 1)", "(+ 1 " + s + ")", "(? (< " + s + " 1) 2 3)", "(? (< 1 " + s
+                    + ") 2 3)", "(? (< 1 2) " + s + " 3)",
+                "(? (< 1 2) 3 " + s + ")", "(~ (- 1 (~ " + s + ")))"};
+            for (String second : seconds) {
+                BreedingHouse h = new BreedingHouse();
+                int fold = Check.tree(h, "(@ x " + second + ")");
+                C.is("the whole can't become " + second, Check.print(h, h.edit(fold, 3, 0)) + Check.print(h,
+                        h.edit(fold, 3, 1)).charAt(1), "x@");
+                C.is("nor + of x and " + second, Check.print(h, h.edit(fold, 1, 0)), "(@ 1 " + second + ")");
+                C.is("x can't become it", h.pairs(Check.tree(h, "x"), fold), 2 + free(second));
+            }
+        }
+        C.editsAre(0, "(@ x (~ s))", 3, "x/(@ x s)");
+        C.editsAre(0, "(@ x (~ e))", 3, "x/(@ x e)");
+        C.editsAre(0, "(@ x (~ y))", 3, "x/(~ y)/(@ x y)");
+        C.editsAre(0, "(@ (@ x s) (~ y))", 3, "(@ x s)/(~ y)/(@ x (~ y))/(@ (@ x s) y)");
+    }
+
+    /** How many numbers of a text have neither s nor e in them. */
+    private static int free(String text) {
+        int many = 0;
+        for (int k = 0; Trees.nodeAt(text, k) >= 0; k++) {
+            String rest = text.substring(Trees.nodeAt(text, k));
+            int end = 0;
+            for (int open = 0; end == 0 || open > 0; end++) {
+                open += rest.charAt(end) == '(' ? 1 : rest.charAt(end) == ')' ? -1 : 0;
+            }
+            String node = rest.substring(0, end);
+            many += node.contains("s") || node.contains("e") || node.startsWith("(<") ? 0 : 1;
+        }
+        return many;
     }
 
     private static void smaller() {
-        C.about("Term 6", "2: each node in order becomes a CONSTANT 0, x, or the CONSTANT 1 (NUMBERS that aren't that already).");
-        edits(0, "0", 2, "x/1");
-        edits(0, "x", 2, "0/1");
-        edits(0, "1", 2, "0/x");
-        edits(0, "2", 2, "0/x/1");
-        edits(0, "y", 2, "0/x/1");
-        edits(0, "(~ 0)", 2, "0/x/1/(~ x)/(~ 1)");
-        edits(0, "(? (! (< 0 x)) 1 y)", 2, "0/x/1/(? (! (< x x)) 1 y)/(? (! (< 1 x)) 1 y)/(? (! (< 0 0)) 1 y)/(? (! (< 0 1)) 1 y)"
-                + "/(? (! (< 0 x)) 0 y)/(? (! (< 0 x)) x y)/(? (! (< 0 x)) 1 0)/(? (! (< 0 x)) 1 x)/(? (! (< 0 x)) 1 1)");
-        edits(0, "(@ x s)", 2, "0/x/1/(@ 0 s)/(@ 1 s)/(@ x 0)/(@ x x)/(@ x 1)");
+        C.about("Term 6", "2: each node in order becomes a CONSTANT 0, x, or the CONSTANT 1 (NUMBERS that aren't "
+                + "that already).");
+        C.editsAre(0, "0", 2, "x/1");
+        C.editsAre(0, "x", 2, "0/1");
+        C.editsAre(0, "1", 2, "0/x");
+        C.editsAre(0, "2", 2, "0/x/1");
+        C.editsAre(0, "y", 2, "0/x/1");
+        C.editsAre(0, "(~ 0)", 2, "0/x/1/(~ x)/(~ 1)");
+        C.editsAre(0, "(? (! (< 0 x)) 1 y)", 2, "0/x/1/(? (! (< x x)) 1 y)/(? (! (< 1 x)) 1 y)/(? (! (< 0 0)) 1 y)/(? "
+                + "(! (< 0 1)) 1 y)"
+                + "/(? (! (< 0 x)) 0 y)/(? (! (< 0 x)) x y)/(? (! (< 0 x)) 1 0)/(? (! (< 0 x)) 1 x)/(? (! (< 0 x)) 1 "
+                + "1)");
+        C.editsAre(0, "(@ x s)", 2, "0/x/1/(@ 0 s)/(@ 1 s)/(@ x 0)/(@ x x)/(@ x 1)");
     }
 
     private static void parts() {
         C.about("Term 6", "3: each node in order becomes its first, second, third part, if that is of its type.");
-        edits(0, "x", 3, "");
-        edits(0, "(+ 1 2)", 3, "1/2");
-        edits(0, "(? (< x y) 1 2)", 3, "1/2");
-        edits(0, "(? (! (< x y)) 1 2)", 3, "1/2/(? (< x y) 1 2)");
-        edits(0, "(? (| (< x y) (= x z)) 1 2)", 3, "1/2/(? (< x y) 1 2)/(? (= x z) 1 2)");
-        edits(0, Trees.chain(12), 3, Check.repeat(Trees.chain(11) + "/", 10) + Trees.chain(11));
+        C.editsAre(0, "x", 3, "");
+        C.editsAre(0, "(+ 1 2)", 3, "1/2");
+        C.editsAre(0, "(? (< x y) 1 2)", 3, "1/2");
+        C.editsAre(0, "(? (! (< x y)) 1 2)", 3, "1/2/(? (< x y) 1 2)");
+        C.editsAre(0, "(? (| (< x y) (= x z)) 1 2)", 3, "1/2/(? (< x y) 1 2)/(? (= x z) 1 2)");
+        C.editsAre(0, Trees.chain(12), 3, Check.repeat(Trees.chain(11) + "/", 10) + Trees.chain(11));
     }
 
     private static void pushes() {
         C.about("Term 6", "CODE: 0: PUSHES as CONSTANTS.");
         for (String[] one : NEXT) {
-            edits(1, one[0], 0, one[1]);
+            C.editsAre(1, one[0], 0, one[1]);
         }
-        edits(1, "x", 0, "");
-        edits(1, "x x b1 ~", 0, "");
-        edits(1, "99 j0", 0, "98 j0/89 j0/-99 j0");
+        C.editsAre(1, "x", 0, "");
+        C.editsAre(1, "x x b1 ~", 0, "");
+        C.editsAre(1, "99 j0", 0, "98 j0/89 j0/-99 j0");
     }
 
     private static void instructionSorts() {
-        C.about("Term 6", "1: of each instruction another SORT (rising) that takes and puts as many, of 0 .. 13 (PUSH 1; from a PUSH to 1 .. 4).");
-        edits(1, "5", 1, "x/y/z/n");
-        edits(1, "1", 1, "x/y/z/n");
-        edits(1, "x", 1, "1/y/z/n");
-        edits(1, "n", 1, "1/x/y/z");
-        many(1, "x ~", 1, 4 + 1);
-        edits(1, "x #", 1, "1 #/y #/z #/n #/x ~");
+        C.about("Term 6", "1: of each instruction another SORT (rising) that takes and puts as many, of 0 .. 13 "
+                + "(PUSH 1; from a PUSH to 1 .. 4).");
+        C.editsAre(1, "5", 1, "x/y/z/n");
+        C.editsAre(1, "1", 1, "x/y/z/n");
+        C.editsAre(1, "x", 1, "1/y/z/n");
+        C.editsAre(1, "n", 1, "1/x/y/z");
+        C.editsMany(1, "x ~", 1, 4 + 1);
+        C.editsAre(1, "x #", 1, "1 #/y #/z #/n #/x ~");
         String[] signs = {"+", "-", "*", "/", "%", "<", "="};
         for (int own = 0; own < 7; own++) {
             BreedingHouse h = new BreedingHouse();
@@ -275,27 +304,37 @@ public final class ChangesEdgesTest {
                 }
             }
         }
-        edits(1, "j0 x", 1, "j0 1/j0 y/j0 z/j0 n");
-        many(1, "x d o", 1, 4);
-        many(1, "x y w b0", 1, 8);
+        C.editsAre(1, "j0 x", 1, "j0 1/j0 y/j0 z/j0 n");
+        C.editsMany(1, "x d o", 1, 4);
+        C.editsMany(1, "x y w b0", 1, 8);
     }
 
     private static void leftOut() {
-        C.about("Term 6", "2: from each place in order 1, 2, 3 instructions are left out; a j or b that passes over all of them passes over so "
-                + "many fewer, one that would come between them isn't SOUND; one that leads to the first of them or ahead stays as it is.");
-        edits(1, "x", 2, "");
-        edits(1, "x ~", 2, "x");
-        edits(1, "x ~ ~", 2, "x ~/x/x ~");
-        edits(1, "x ~ ~ ~", 2, "x ~ ~/x ~/x/x ~ ~/x ~/x ~ ~");
-        edits(1, "x ~ ~ ~ ~", 2, "x ~ ~ ~/x ~ ~/x ~/x ~ ~ ~/x ~ ~/x ~/x ~ ~ ~/x ~ ~/x ~ ~ ~");
-        edits(1, "x y +", 2, "x");
-        edits(1, "x x b3 ~ ~ ~ ~", 2, "x ~ ~ ~ ~/x ~ ~ ~/x x b2 ~ ~ ~/x x b1 ~ ~/x x b0 ~/x x b2 ~ ~ ~/x x b1 ~ ~/x x b2 ~ ~ ~/x x b3 ~ ~ ~");
-        edits(1, "x x b2 ~ j1 ~ ~", 2, "x x b1 j1 ~ ~/x x b0 ~ ~/x x b1 ~ ~ ~/x x b2 ~ j0 ~/x x b2 ~ j1 ~");
+        C.about("Term 6", "2: from each place in order 1, 2, 3 instructions are left out; a j or b that passes over "
+                + "all of them passes over so many fewer, one that would come between them isn't SOUND; one that "
+                + "leads to the first of them or ahead stays as it is.");
+        C.editsAre(1, "x", 2, "");
+        C.editsAre(1, "x ~", 2, "x");
+        C.editsAre(1, "x ~ ~", 2, "x ~/x/x ~");
+        C.editsAre(1, "x ~ ~ ~", 2, "x ~ ~/x ~/x/x ~ ~/x ~/x ~ ~");
+        C.editsAre(1, "x ~ ~ ~ ~", 2, "x ~ ~ ~/x ~ ~/x ~/x ~ ~ ~/x ~ ~/x ~/x ~ ~ ~/x ~ ~/x ~ ~ ~");
+        C.editsAre(1, "x y +", 2, "x");
+        C.editsAre(1, "x x b3 ~ ~ ~ ~", 2, "x ~ ~ ~ ~/x ~ ~ ~/x x b2 ~ ~ ~/x x b1 ~ ~/x x b0 ~/x x b2 ~ ~ ~/x x b1 ~ "
+                + "~/x x b2 ~ ~ ~/x x b3 ~ ~ ~");
+        C.editsAre(1, "x x b2 ~ j1 ~ ~", 2, "x x b1 j1 ~ ~/x x b0 ~ ~/x x b1 ~ ~ ~/x x b2 ~ j0 ~/x x b2 ~ j1 ~");
+    }
+
+    private static void jumpLeftOut() {
+        C.about("Term 6", "a j or b that passes over all of them passes over so many fewer");
+        BreedingHouse h = new BreedingHouse();
+        int b = Check.code(h, "x y b2 ~ j2 5 + ~");
+        C.is("the jump itself is left out", ("/" + Check.edits(h, b, 2) + "/").contains("/x y b1 ~ 5 + ~/"), true);
     }
 
     private static void comeIn() {
-        C.about("Term 6", "a j or b that leads behind that place passes over so many more (one that leads to it leads ahead of what has come)");
-        edits(1, "x", 3, "x ~/x 1 +/x 1 -/x x +/x d *");
+        C.about("Term 6", "a j or b that leads behind that place passes over so many more (one that leads to it "
+                + "leads ahead of what has come)");
+        C.editsAre(1, "x", 3, "x ~/x 1 +/x 1 -/x x +/x d *");
         BreedingHouse h = new BreedingHouse();
         int b = Check.code(h, "x x b1 ~ ~");
         String[] due = {"x ~ x b1 ~ ~", "x 1 + x b1 ~ ~", "x 1 - x b1 ~ ~", "x x + x b1 ~ ~", "x d * x b1 ~ ~",
@@ -308,7 +347,8 @@ public final class ChangesEdgesTest {
             C.is("edit " + i, Check.print(h, h.edit(b, 3, i)), due[i]);
         }
         int j = Check.code(h, "x b2 1 j1 2");
-        C.is("j that leads to the end leads ahead of what comes there", Check.print(h, h.edit(j, 3, h.edits(j, 3) - 1)), "x b2 1 j1 2 d *");
+        C.is("j that leads to the end leads ahead of what comes there", Check.print(h, h.edit(j, 3, h.edits(j, 3) - 1)),
+                "x b2 1 j1 2 d *");
         int over = Check.code(h, "x x b2 ~ j1 ~ ~");
         C.is("j leads over what has come, b ahead of it",
                 ("/" + Check.edits(h, over, 3) + "/").contains("/x x b2 ~ j2 ~ ~ ~/"), true);
@@ -317,33 +357,38 @@ public final class ChangesEdgesTest {
 
     private static void codeIsFull() {
         C.about("Term 3", "CODE: 1 to 60 INSTRUCTIONS");
-        many(1, "x" + Check.repeat(" ~", 57), 3, 58 * 5);
-        many(1, "x" + Check.repeat(" ~", 58), 3, 59);
-        many(1, "x" + Check.repeat(" ~", 59), 3, 0);
-        many(1, "x", 2, 0);
-        many(1, "x ~", 2, 1);
+        C.editsMany(1, "x" + Check.repeat(" ~", 57), 3, 58 * 5);
+        C.editsMany(1, "x" + Check.repeat(" ~", 58), 3, 59);
+        C.editsMany(1, "x" + Check.repeat(" ~", 59), 3, 0);
+        C.editsMany(1, "x", 2, 0);
+        C.editsMany(1, "x ~", 2, 1);
     }
 
     private static void pileIsFull() {
         C.about("Term 6", "what is told and leaves it SOUND");
-        many(1, "x" + Check.repeat(" x", 7) + Check.repeat(" +", 7), 3, 7 * 5 + 1 + 7 * 5);
-        many(1, "x" + Check.repeat(" x", 6) + Check.repeat(" +", 6), 3, 13 * 5);
+        C.editsMany(1, "x" + Check.repeat(" x", 7) + Check.repeat(" +", 7), 3, 7 * 5 + 1 + 7 * 5);
+        C.editsMany(1, "x" + Check.repeat(" x", 6) + Check.repeat(" +", 6), 3, 13 * 5);
     }
 
     private static void outputs() {
         C.about("Term 6", "MACHINES: 0: of each OUTPUT as of CONSTANTS.");
         for (String[] one : NEXT) {
-            edits(2, one[0] + ":0000", 0, one[1].replace("/", ":0000/") + ":0000");
+            C.editsAre(2, one[0] + ":0000", 0, one[1].replace("/", ":0000/") + ":0000");
         }
-        edits(2, "99:0001;0:0000", 0, "98:0001;0:0000/89:0001;0:0000/-99:0001;0:0000/99:0001;1:0000/99:0001;-1:0000/99:0001;10:0000/99:0001;-10:0000");
+        C.editsAre(2, "99:0001;0:0000", 0,
+                "98:0001;0:0000/89:0001;0:0000/-99:0001;0:0000/99:0001;1:0000/99:0001;-1:0000"
+                + "/99:0001;10:0000/99:0001;-10:0000");
     }
 
     private static void edges() {
         C.about("Term 6", "1: of each state and CLASS each other state, rising.");
-        edits(2, "1:0000", 1, "");
-        edits(2, "1:0101;2:1111", 1, "1:1101;2:1111/1:0001;2:1111/1:0111;2:1111/1:0100;2:1111/1:0101;2:0111/1:0101;2:1011/1:0101;2:1101/1:0101;2:1110");
-        many(2, "1:0000" + Check.repeat(";1:5555", 5), 1, 6 * 4 * 5);
-        edits(2, "1:1111;2:0000;3:0000", 1, "1:0111;2:0000;3:0000/1:2111;2:0000;3:0000/1:1011;2:0000;3:0000/1:1211;2:0000;3:0000"
+        C.editsAre(2, "1:0000", 1, "");
+        C.editsAre(2, "1:0101;2:1111", 1,
+                "1:1101;2:1111/1:0001;2:1111/1:0111;2:1111/1:0100;2:1111/1:0101;2:0111"
+                + "/1:0101;2:1011/1:0101;2:1101/1:0101;2:1110");
+        C.editsMany(2, "1:0000" + Check.repeat(";1:5555", 5), 1, 6 * 4 * 5);
+        C.editsAre(2, "1:1111;2:0000;3:0000", 1,
+                "1:0111;2:0000;3:0000/1:2111;2:0000;3:0000/1:1011;2:0000;3:0000/1:1211;2:0000;3:0000"
                 + "/1:1101;2:0000;3:0000/1:1121;2:0000;3:0000/1:1110;2:0000;3:0000/1:1112;2:0000;3:0000"
                 + "/1:1111;2:1000;3:0000/1:1111;2:2000;3:0000/1:1111;2:0100;3:0000/1:1111;2:0200;3:0000"
                 + "/1:1111;2:0010;3:0000/1:1111;2:0020;3:0000/1:1111;2:0001;3:0000/1:1111;2:0002;3:0000"
@@ -352,106 +397,107 @@ public final class ChangesEdgesTest {
     }
 
     private static void newStates() {
-        C.about("Term 6", "2: (below 6 states) for each state and CLASS in order: a new last state like the one to which that EDGE leads, and "
-                + "the EDGE leads there.");
-        edits(2, "7:0000", 2, "7:1000;7:0000/7:0100;7:0000/7:0010;7:0000/7:0001;7:0000");
-        many(2, "1:0000" + Check.repeat(";1:0000", 4), 2, 20);
-        many(2, "1:0000" + Check.repeat(";1:0000", 5), 2, 0);
+        C.about("Term 6", "2: (below 6 states) for each state and CLASS in order: a new last state like the one to "
+                + "which that EDGE leads, and the EDGE leads there.");
+        C.editsAre(2, "7:0000", 2, "7:1000;7:0000/7:0100;7:0000/7:0010;7:0000/7:0001;7:0000");
+        C.editsAre(2, "3:0010;4:1111", 2,
+                "3:2010;4:1111;3:0010/3:0210;4:1111;3:0010/3:0020;4:1111;4:1111/3:0012;4:1111;3:0010"
+                + "/3:0010;4:2111;4:1111/3:0010;4:1211;4:1111/3:0010;4:1121;4:1111/3:0010;4:1112;4:1111");
+        C.editsMany(2, "1:0000" + Check.repeat(";1:0000", 4), 2, 20);
+        C.editsMany(2, "1:0000" + Check.repeat(";1:0000", 5), 2, 0);
         BreedingHouse h = new BreedingHouse();
         int five = Check.machine(h, "1:0123;2:4444;3:3333;4:2222;-99:0000");
-        C.is("the last state's class 3", Check.print(h, h.edit(five, 2, 19)), "1:0123;2:4444;3:3333;4:2222;-99:0005;1:0123");
+        C.is("the last state's class 3", Check.print(h, h.edit(five, 2, 19)),
+                "1:0123;2:4444;3:3333;4:2222;-99:0005;1:0123");
         C.is("it has 6", h.birth(h.births() - 1, 1), 6);
     }
 
     private static void statesLeftOut() {
         C.about("Term 6", "3: each state but 0 is left out: what led there leads to state 0.");
-        edits(2, "1:0000", 3, "");
-        edits(2, "1:0101;2:1111", 3, "1:0000");
-        edits(2, "1:0122;2:2221;3:1000", 3, "1:0011;3:0000/1:0100;2:0001");
-        edits(2, "1:5432;1:0000;1:0000;1:0000;1:0000;9:5050", 3, "1:4321;1:0000;1:0000;1:0000;9:4040/1:4320;1:0000;1:0000;1:0000;9:4040/1:4302;1:0000;1:0000;1:0000;9:4040"
-                + "/1:4032;1:0000;1:0000;1:0000;9:4040/1:0432;1:0000;1:0000;1:0000;1:0000");
+        C.editsAre(2, "1:0000", 3, "");
+        C.editsAre(2, "1:0101;2:1111", 3, "1:0000");
+        C.editsAre(2, "1:0122;2:2221;3:1000", 3, "1:0011;3:0000/1:0100;2:0001");
+        C.editsAre(2, "1:5432;1:0000;1:0000;1:0000;1:0000;9:5050", 3,
+                "1:4321;1:0000;1:0000;1:0000;9:4040/1:4320;1:0000;1:0000;1:0000;9:4040"
+                + "/1:4302;1:0000;1:0000;1:0000;9:4040/1:4032;1:0000;1:0000;1:0000;9:4040"
+                + "/1:0432;1:0000;1:0000;1:0000;1:0000");
     }
 
     private static void otherComparators() {
         C.about("Term 6", "NETS: 0: each COMPARATOR becomes each other (i rising, then j).");
-        edits(3, "2:01", 0, "");
-        edits(3, "2:", 0, "");
-        edits(3, "3:02", 0, "3:01/3:12");
-        edits(3, "3:01,12", 0, "3:02,12/3:12,12/3:01,01/3:01,02");
-        edits(3, "4:23", 0, "4:01/4:02/4:03/4:12/4:13");
-        many(3, "8:01" + Check.repeat(",67", 39), 0, 40 * 27);
+        C.editsAre(3, "2:01", 0, "");
+        C.editsAre(3, "2:", 0, "");
+        C.editsAre(3, "3:02", 0, "3:01/3:12");
+        C.editsAre(3, "3:01,12", 0, "3:02,12/3:12,12/3:01,01/3:01,02");
+        C.editsAre(3, "4:23", 0, "4:01/4:02/4:03/4:12/4:13");
+        C.editsMany(3, "8:01" + Check.repeat(",67", 39), 0, 40 * 27);
     }
 
     private static void comparatorsLeftOut() {
         C.about("Term 6", "1: each is left out.");
-        edits(3, "2:", 1, "");
-        edits(3, "2:01", 1, "2:");
-        edits(3, "3:01,12,02", 1, "3:12,02/3:01,02/3:01,12");
-        many(3, "8:01" + Check.repeat(",67", 39), 1, 40);
+        C.editsAre(3, "2:", 1, "");
+        C.editsAre(3, "2:01", 1, "2:");
+        C.editsAre(3, "3:01,12,02", 1, "3:12,02/3:01,02/3:01,12");
+        C.editsMany(3, "8:01" + Check.repeat(",67", 39), 1, 40);
     }
 
     private static void newComparators() {
         C.about("Term 6", "2: ahead of each place, the end too, comes each (i rising, then j).");
-        edits(3, "2:", 2, "2:01");
-        edits(3, "3:", 2, "3:01/3:02/3:12");
-        edits(3, "3:02", 2, "3:01,02/3:02,02/3:12,02/3:02,01/3:02,02/3:02,12");
+        C.editsAre(3, "2:", 2, "2:01");
+        C.editsAre(3, "3:", 2, "3:01/3:02/3:12");
+        C.editsAre(3, "3:02", 2, "3:01,02/3:02,02/3:12,02/3:02,01/3:02,02/3:02,12");
         C.about("Term 4", "NETS: 2 to 8 LINES, at most 40 COMPARATORS of two lines i < j.");
-        many(3, "2:01" + Check.repeat(",01", 37), 2, 39);
-        many(3, "2:01" + Check.repeat(",01", 38), 2, 40);
-        many(3, "2:01" + Check.repeat(",01", 39), 2, 0);
-        many(3, "8:", 2, 28);
+        C.editsMany(3, "2:01" + Check.repeat(",01", 37), 2, 39);
+        C.editsMany(3, "2:01" + Check.repeat(",01", 38), 2, 40);
+        C.editsMany(3, "2:01" + Check.repeat(",01", 39), 2, 0);
+        C.editsMany(3, "8:", 2, 28);
     }
 
     private static void exchanged() {
         C.about("Term 6", "3: each but the last is exchanged with the next one, unless both are the same.");
-        edits(3, "2:", 3, "");
-        edits(3, "2:01", 3, "");
-        edits(3, "2:01,01", 3, "");
-        edits(3, "3:01,02", 3, "3:02,01");
-        edits(3, "3:01,12", 3, "3:12,01");
-        edits(3, "3:02,12", 3, "3:12,02");
-        edits(3, "3:01,12,12,01", 3, "3:12,01,12,01/3:01,12,01,12");
-    }
-
-    private static void pairsAre(int kind, String a, String b, int due) {
-        BreedingHouse h = new BreedingHouse();
-        C.is("pairs of " + a + " and " + b, h.pairs(Check.read(h, kind, a), Check.read(h, kind, b)), due);
+        C.editsAre(3, "2:", 3, "");
+        C.editsAre(3, "2:01", 3, "");
+        C.editsAre(3, "2:01,01", 3, "");
+        C.editsAre(3, "3:01,02", 3, "3:02,01");
+        C.editsAre(3, "3:01,12", 3, "3:12,01");
+        C.editsAre(3, "3:02,12", 3, "3:12,02");
+        C.editsAre(3, "3:01,12,12,01", 3, "3:12,01,12,01/3:01,12,01,12");
     }
 
     private static void pairsOfTrees() {
         C.about("Term 2", "it has at most 60 NODES, each at most 12 deep (the whole is 1 deep)");
-        pairsAre(0, "x", Trees.ofSize(60), 60);
-        pairsAre(0, Trees.ofSize(60), "x", 60);
+        C.pairsMany(0, "x", Trees.ofSize(60), 60);
+        C.pairsMany(0, Trees.ofSize(60), "x", 60);
         // For the whole of 60 nodes 2 can come, and for each node but the leaves, of which it has 30; for leaves one.
-        pairsAre(0, Trees.ofSize(60), "(~ x)", 60 + 30);
+        C.pairsMany(0, Trees.ofSize(60), "(~ x)", 60 + 30);
         // Of 59 nodes 30 are leaves: for each node 1 or 2 can come, and 3 for all but these.
-        pairsAre(0, Trees.ofSize(59), "(~ (~ x))", 59 + 59 + 29);
-        pairsAre(0, Trees.chain(12), "(~ x)", 12 + 11);
-        pairsAre(0, Trees.chain(11), "(~ x)", 11 + 11);
-        pairsAre(0, Trees.chain(12), Trees.chain(12), 12 * 13 / 2);
-        pairsAre(0, "(? (< x y) 1 2)", "x", 5);
-        pairsAre(0, "(? (< x y) 1 2)", "(? (! (< x y)) 1 2)", 5 * 5 + 2);
+        C.pairsMany(0, Trees.ofSize(59), "(~ (~ x))", 59 + 59 + 29);
+        C.pairsMany(0, Trees.chain(12), "(~ x)", 12 + 11);
+        C.pairsMany(0, Trees.chain(11), "(~ x)", 11 + 11);
+        C.pairsMany(0, Trees.chain(12), Trees.chain(12), 12 * 13 / 2);
+        C.pairsMany(0, "(? (< x y) 1 2)", "x", 5);
+        C.pairsMany(0, "(? (< x y) 1 2)", "(? (! (< x y)) 1 2)", 5 * 5 + 2);
     }
 
     private static void pairsOfFolds() {
         C.about("Term 2", "s and e stand in second parts of FOLDS alone, no FOLD stands in the second part of one");
-        pairsAre(0, "x", "(@ x s)", 2);
-        pairsAre(0, "(@ x y)", "(@ x s)", 2 + 2 + 2);
-        pairsAre(0, "(@ x y)", "(@ x (+ s 1))", 3 + 3 + 4);
-        pairsAre(0, "(@ x (~ y))", "(@ 1 (~ e))", 2 + 2 + 3 + 3);
+        C.pairsMany(0, "x", "(@ x s)", 2);
+        C.pairsMany(0, "(@ x y)", "(@ x s)", 2 + 2 + 2);
+        C.pairsMany(0, "(@ x y)", "(@ x (+ s 1))", 3 + 3 + 4);
+        C.pairsMany(0, "(@ x (~ y))", "(@ 1 (~ e))", 2 + 2 + 3 + 3);
     }
 
     private static void pairsOfCode() {
-        C.about("Term 6", "CODE: i, j, each 0 .. its SIZE: the first i instructions of the first, those of the second from j on (each keeps its "
-                + "distance; 1 to 60).");
-        pairsAre(1, "x", "y", 2);
-        pairsAre(1, "x ~", "y ~", 1 + 4);
-        pairsAre(1, "x" + Check.repeat(" ~", 59), "y", 1 + 60);
+        C.about("Term 6", "CODE: i, j, each 0 .. its SIZE: the first i instructions of the first, those of the "
+                + "second from j on (each keeps its distance; 1 to 60).");
+        C.pairsMany(1, "x", "y", 2);
+        C.pairsMany(1, "x ~", "y ~", 1 + 4);
+        C.pairsMany(1, "x" + Check.repeat(" ~", 59), "y", 1 + 60);
         // From 1 .. 60 of the first and 0 or 1 of the second, but 60 and 1.
-        pairsAre(1, "x" + Check.repeat(" ~", 59), "y ~", 1 + 2 * 60 - 1);
-        pairsAre(1, "x" + Check.repeat(" ~", 59), "y" + Check.repeat(" ~", 59), 1 + 60 * 61 / 2);
+        C.pairsMany(1, "x" + Check.repeat(" ~", 59), "y ~", 1 + 2 * 60 - 1);
+        C.pairsMany(1, "x" + Check.repeat(" ~", 59), "y" + Check.repeat(" ~", 59), 1 + 60 * 61 / 2);
         // "x x b1" would lead behind the end.
-        pairsAre(1, "x x b1 ~", "y", 1 + 1 + 1);
+        C.pairsMany(1, "x x b1 ~", "y", 1 + 1 + 1);
         BreedingHouse h = new BreedingHouse();
         int a = Check.code(h, "x x b1 ~");
         int b = Check.code(h, "y ~ ~ ~");
@@ -470,14 +516,14 @@ public final class ChangesEdgesTest {
     }
 
     private static void pairsOfMachines() {
-        C.about("Term 6", "MACHINES of as many states: masks 1, 2, .. with a bit for each state, but all bits: state k with all its EDGES from "
-                + "the second if bit k is 1.");
+        C.about("Term 6", "MACHINES of as many states: masks 1, 2, .. with a bit for each state, but all bits: state "
+                + "k with all its EDGES from the second if bit k is 1.");
         for (int states = 1; states <= 6; states++) {
             String text = "1:0000" + Check.repeat(";1:0000", states - 1);
-            pairsAre(2, text, text, (1 << states) - 2);
+            C.pairsMany(2, text, text, (1 << states) - 2);
             if (states < 6) {
-                pairsAre(2, text, text + ";1:0000", 0);
-                pairsAre(2, text + ";1:0000", text, 0);
+                C.pairsMany(2, text, text + ";1:0000", 0);
+                C.pairsMany(2, text + ";1:0000", text, 0);
             }
         }
         BreedingHouse h = new BreedingHouse();
@@ -489,17 +535,32 @@ public final class ChangesEdgesTest {
 
     private static void pairsOfNets() {
         C.about("Term 6", "NETS of as many lines: i, j as for CODE (at most 40).");
-        pairsAre(3, "2:", "2:", 1);
-        pairsAre(3, "2:01", "2:", 2);
-        pairsAre(3, "2:01", "2:01", 4);
-        pairsAre(3, "2:", "3:", 0);
-        pairsAre(3, "8:01", "7:01", 0);
+        C.pairsMany(3, "2:", "2:", 1);
+        C.pairsMany(3, "2:01", "2:", 2);
+        C.pairsMany(3, "2:01", "2:01", 4);
+        C.pairsMany(3, "2:", "3:", 0);
+        C.pairsMany(3, "8:01", "7:01", 0);
         String forty = "2:01" + Check.repeat(",01", 39);
-        pairsAre(3, forty, "2:", 41);
-        pairsAre(3, "2:", forty, 41);
-        pairsAre(3, forty, "2:01", 41 * 2 - 1);
-        pairsAre(3, "2:01", forty, 41 * 2 - 1);
-        pairsAre(3, forty, forty, 41 * 42 / 2);
+        C.pairsMany(3, forty, "2:", 41);
+        C.pairsMany(3, "2:", forty, 41);
+        C.pairsMany(3, forty, "2:01", 41 * 2 - 1);
+        C.pairsMany(3, "2:01", forty, 41 * 2 - 1);
+        C.pairsMany(3, forty, forty, 41 * 42 / 2);
+    }
+
+    private static void pairsByTurns() {
+        C.about("Promise 32", "How many PAIRS two programs have");
+        BreedingHouse h = new BreedingHouse();
+        int code = Check.code(h, "x y + z w -");
+        int net = Check.net(h, "3:01,12,02,01,12,02");
+        int tree = Check.tree(h, "(? (< x y) 1 2)");
+        for (int k = 0; k < 3; k++) {
+            // Heights 0, 1, 2, 1, 2, 2, 1: one of 0, three of 1, three of 2.
+            C.is("code", h.pairs(code, code), 1 + 9 + 9);
+            C.is("nets", h.pairs(net, net), 49);
+            C.is("trees", h.pairs(tree, tree), 26);
+            C.is("two kinds", h.pairs(tree, code), 0);
+        }
     }
 
     private static void noPairs() {
@@ -541,7 +602,8 @@ public final class ChangesEdgesTest {
     private static void anotherHowOfEdit() {
         C.about("Promise 30", "IllegalArgumentException: how isn't 0 .. 3.");
         BreedingHouse h = new BreedingHouse();
-        int[] births = {Check.tree(h, "(+ 1 2)"), Check.code(h, "x ~"), Check.machine(h, "1:0001;2:0000"), Check.net(h, "3:01,12")};
+        int[] births = {Check.tree(h, "(+ 1 2)"), Check.code(h, "x ~"), Check.machine(h, "1:0001;2:0000"), Check.net(h,
+                "3:01,12")};
         for (int b : births) {
             for (int how : new int[] {-1, 4, 5, LEAST, MOST}) {
                 C.fails("edit by " + how, Check.ARGUMENT, () -> h.edit(b, how, 0));
@@ -591,8 +653,10 @@ public final class ChangesEdgesTest {
     private static void withoutEdits() {
         C.about("Promise 31", "(without any the child is the same)");
         BreedingHouse h = new BreedingHouse();
-        int[][] none = {{Check.tree(h, "x"), 0}, {Check.tree(h, "x"), 3}, {Check.code(h, "x"), 2}, {Check.code(h, "x"), 0},
-            {Check.machine(h, "1:0000"), 1}, {Check.machine(h, "1:0000"), 3}, {Check.machine(h, "1:0000" + Check.repeat(";1:0000", 5)), 2},
+        int[][] none = {{Check.tree(h, "x"), 0}, {Check.tree(h, "x"), 3}, {Check.code(h, "x"), 2}, {Check.code(h, "x"),
+                0},
+            {Check.machine(h, "1:0000"), 1}, {Check.machine(h, "1:0000"), 3}, {Check.machine(h, "1:0000"
+            + Check.repeat(";1:0000", 5)), 2},
             {Check.net(h, "2:"), 0}, {Check.net(h, "2:"), 1}, {Check.net(h, "2:01"), 0}, {Check.net(h, "2:"), 3},
             {Check.net(h, "2:01" + Check.repeat(",01", 39)), 2}, {Check.code(h, "x" + Check.repeat(" ~", 59)), 3}};
         for (int[] one : none) {
@@ -706,7 +770,8 @@ public final class ChangesEdgesTest {
             int child = h.change(t, 4, seed);
             C.is("6 nodes", h.birth(child, 1), 6);
             C.is("< or =", h.item(child, 1, 0), place < 196 ? 15 : 16);
-            C.is("its second leaf", place % 14 < 10 ? h.item(child, 3, 1) : h.item(child, 3, 0), place % 14 < 10 ? place % 14 : place % 14 - 9);
+            C.is("its second leaf", place % 14 < 10 ? h.item(child, 3, 1) : h.item(child, 3, 0), place % 14 < 10
+                    ? place % 14 : place % 14 - 9);
         }
         long seed = seedFor(6, 1, 3);
         // Of size 4: ! of 392 truths, then < and = of 14 and 28, or of 28 and 14.

@@ -15,59 +15,48 @@ public final class ChangesTest {
         C.end();
     }
 
-    private static void edits(int kind, String text, int how, String due) {
-        BreedingHouse h = new BreedingHouse();
-        int b = Check.read(h, kind, text);
-        C.is("edits " + how + " of " + text, Check.edits(h, b, how), due);
-    }
-
-    private static void many(int kind, String text, int how, int due) {
-        BreedingHouse h = new BreedingHouse();
-        C.is("edits " + how + " of " + text, h.edits(Check.read(h, kind, text), how), due);
-    }
-
     private static void treeEdits() {
-        edits(0, "(+ x 5)", 0, "(+ x 6)/(+ x 4)/(+ x 15)/(+ x -5)/(+ x -5)");
-        edits(0, "(+ 0 -99)", 0, "(+ 1 -99)/(+ -1 -99)/(+ 10 -99)/(+ -10 -99)/(+ 0 -98)/(+ 0 -89)/(+ 0 99)");
-        edits(0, "90", 0, "91/89/80/-90");
-        edits(0, "x", 0, "");
-        edits(0, "x", 1, "1/y/z/n");
-        edits(0, "7", 1, "x/y/z/n");
-        edits(0, "(~ 0)", 1, "(# 0)/(~ x)/(~ y)/(~ z)/(~ n)");
-        edits(0, "(@ 1 s)", 1, "(@ x s)/(@ y s)/(@ z s)/(@ n s)/(@ 1 1)/(@ 1 x)/(@ 1 y)/(@ 1 z)/(@ 1 n)/(@ 1 e)");
-        many(0, "(@ 1 2)", 1, 5 + 4 + 6);
-        many(0, "(+ (@ 1 2) y)", 1, 5 + 5 + 4 + 6 + 4);
-        many(0, "(+ y (@ 1 2))", 1, 4 + 4 + 5 + 4 + 6);
-        many(0, "(@ (@ 1 2) (+ s 3))", 1, 0 + 5 + 4 + 6 + 4 + 6 + 6);
-        edits(0, "(? (< 1 2) 3 4)", 2, "0/x/1/(? (< 0 2) 3 4)/(? (< x 2) 3 4)/(? (< 1 0) 3 4)/(? (< 1 x) 3 4)"
+        C.editsAre(0, "(+ x 5)", 0, "(+ x 6)/(+ x 4)/(+ x 15)/(+ x -5)/(+ x -5)");
+        C.editsAre(0, "(+ 0 -99)", 0, "(+ 1 -99)/(+ -1 -99)/(+ 10 -99)/(+ -10 -99)/(+ 0 -98)/(+ 0 -89)/(+ 0 99)");
+        C.editsAre(0, "90", 0, "91/89/80/-90");
+        C.editsAre(0, "x", 0, "");
+        C.editsAre(0, "x", 1, "1/y/z/n");
+        C.editsAre(0, "7", 1, "x/y/z/n");
+        C.editsAre(0, "(~ 0)", 1, "(# 0)/(~ x)/(~ y)/(~ z)/(~ n)");
+        C.editsAre(0, "(@ 1 s)", 1, "(@ x s)/(@ y s)/(@ z s)/(@ n s)/(@ 1 1)/(@ 1 x)/(@ 1 y)/(@ 1 z)/(@ 1 n)/(@ 1 e)");
+        C.editsMany(0, "(@ 1 2)", 1, 5 + 4 + 6);
+        C.editsMany(0, "(+ (@ 1 2) y)", 1, 5 + 5 + 4 + 6 + 4);
+        C.editsMany(0, "(+ y (@ 1 2))", 1, 4 + 4 + 5 + 4 + 6);
+        C.editsMany(0, "(@ (@ 1 2) (+ s 3))", 1, 0 + 5 + 4 + 6 + 4 + 6 + 6);
+        C.editsAre(0, "(? (< 1 2) 3 4)", 2, "0/x/1/(? (< 0 2) 3 4)/(? (< x 2) 3 4)/(? (< 1 0) 3 4)/(? (< 1 x) 3 4)"
                 + "/(? (< 1 1) 3 4)/(? (< 1 2) 0 4)/(? (< 1 2) x 4)/(? (< 1 2) 1 4)/(? (< 1 2) 3 0)/(? (< 1 2) 3 x)/(? (< 1 2) 3 1)");
-        many(0, "(? (! (& (< x y) (| (= 1 2) (< 3 4)))) 0 1)", 1, 1 + 1 + 4 + 4 + 1 + 1 + 4 + 4 + 1 + 4 + 4 + 4 + 4);
-        edits(0, "(? (! (! (< x y))) 1 2)", 3, "1/2/(? (! (< x y)) 1 2)/(? (! (< x y)) 1 2)");
-        edits(0, "(? (& (< x y) (= 1 2)) 3 4)", 3, "3/4/(? (< x y) 3 4)/(? (= 1 2) 3 4)");
-        edits(0, "(@ x (+ s 1))", 3, "x/(@ x s)/(@ x 1)");
-        edits(0, "(@ x (+ y 1))", 3, "x/(+ y 1)/(@ x y)/(@ x 1)");
-        edits(0, "(~ (# x))", 3, "(# x)/(~ x)");
-        edits(0, "n", 3, "");
+        C.editsMany(0, "(? (! (& (< x y) (| (= 1 2) (< 3 4)))) 0 1)", 1, 1 + 1 + 4 + 4 + 1 + 1 + 4 + 4 + 1 + 4 + 4 + 4 + 4);
+        C.editsAre(0, "(? (! (! (< x y))) 1 2)", 3, "1/2/(? (! (< x y)) 1 2)/(? (! (< x y)) 1 2)");
+        C.editsAre(0, "(? (& (< x y) (= 1 2)) 3 4)", 3, "3/4/(? (< x y) 3 4)/(? (= 1 2) 3 4)");
+        C.editsAre(0, "(@ x (+ s 1))", 3, "x/(@ x s)/(@ x 1)");
+        C.editsAre(0, "(@ x (+ y 1))", 3, "x/(+ y 1)/(@ x y)/(@ x 1)");
+        C.editsAre(0, "(~ (# x))", 3, "(# x)/(~ x)");
+        C.editsAre(0, "n", 3, "");
     }
 
     private static void codeEdits() {
-        edits(1, "5 j0 -98 +", 0, "6 j0 -98 +/4 j0 -98 +/15 j0 -98 +/-5 j0 -98 +/-5 j0 -98 +"
+        C.editsAre(1, "5 j0 -98 +", 0, "6 j0 -98 +/4 j0 -98 +/15 j0 -98 +/-5 j0 -98 +/-5 j0 -98 +"
                 + "/5 j0 -97 +/5 j0 -99 +/5 j0 -88 +/5 j0 98 +");
-        edits(1, "5 d o", 1, "x d o/y d o/z d o/n d o");
-        many(1, "5 ~ d - o n", 1, 4 + 1 + 0 + 6 + 0 + 4);
-        many(1, "x y w b0 j0", 1, 4 + 4);
-        edits(1, "5 ~", 1, "x ~/y ~/z ~/n ~/5 #");
-        edits(1, "n d <", 1, "1 d </x d </y d </z d </n d +/n d -/n d */n d //n d %/n d =");
-        edits(1, "x", 2, "");
-        edits(1, "x ~ ~", 2, "x ~/x/x ~");
-        edits(1, "x 0 < b2 1 j1 7", 2, "x b2 1 j1 7/x 0 < b0 7");
-        many(1, "x 0 < b2 1 j1 7", 3, 25);
-        edits(1, "x y b1 ~ ~ ~ ~", 2, "x ~ ~ ~ ~/x ~ ~ ~/x y b0 ~ ~ ~/x y b1 ~ ~ ~/x y b1 ~ ~/x y b1 ~"
+        C.editsAre(1, "5 d o", 1, "x d o/y d o/z d o/n d o");
+        C.editsMany(1, "5 ~ d - o n", 1, 4 + 1 + 0 + 6 + 0 + 4);
+        C.editsMany(1, "x y w b0 j0", 1, 4 + 4);
+        C.editsAre(1, "5 ~", 1, "x ~/y ~/z ~/n ~/5 #");
+        C.editsAre(1, "n d <", 1, "1 d </x d </y d </z d </n d +/n d -/n d */n d //n d %/n d =");
+        C.editsAre(1, "x", 2, "");
+        C.editsAre(1, "x ~ ~", 2, "x ~/x/x ~");
+        C.editsAre(1, "x 0 < b2 1 j1 7", 2, "x b2 1 j1 7/x 0 < b0 7");
+        C.editsMany(1, "x 0 < b2 1 j1 7", 3, 25);
+        C.editsAre(1, "x y b1 ~ ~ ~ ~", 2, "x ~ ~ ~ ~/x ~ ~ ~/x y b0 ~ ~ ~/x y b1 ~ ~ ~/x y b1 ~ ~/x y b1 ~"
                 + "/x y b1 ~ ~ ~/x y b1 ~ ~/x y b1 ~ ~ ~");
-        edits(1, "x", 3, "x ~/x 1 +/x 1 -/x x +/x d *");
-        many(1, "x" + Check.repeat(" ~", 59), 3, 0);
-        many(1, "x" + Check.repeat(" ~", 58), 3, 59);
-        many(1, "x" + Check.repeat(" ~", 57), 3, 58 * 5);
+        C.editsAre(1, "x", 3, "x ~/x 1 +/x 1 -/x x +/x d *");
+        C.editsMany(1, "x" + Check.repeat(" ~", 59), 3, 0);
+        C.editsMany(1, "x" + Check.repeat(" ~", 58), 3, 59);
+        C.editsMany(1, "x" + Check.repeat(" ~", 57), 3, 58 * 5);
         jumps();
     }
 
@@ -90,30 +79,30 @@ public final class ChangesTest {
     }
 
     private static void machineEdits() {
-        edits(2, "0:0000", 0, "1:0000/-1:0000/10:0000/-10:0000");
-        edits(2, "0:0000", 1, "");
-        edits(2, "3:0010;4:1111", 1, "3:1010;4:1111/3:0110;4:1111/3:0000;4:1111/3:0011;4:1111"
+        C.editsAre(2, "0:0000", 0, "1:0000/-1:0000/10:0000/-10:0000");
+        C.editsAre(2, "0:0000", 1, "");
+        C.editsAre(2, "3:0010;4:1111", 1, "3:1010;4:1111/3:0110;4:1111/3:0000;4:1111/3:0011;4:1111"
                 + "/3:0010;4:0111/3:0010;4:1011/3:0010;4:1101/3:0010;4:1110");
-        edits(2, "3:0010;4:1111", 2, "3:2010;4:1111;3:0010/3:0210;4:1111;3:0010/3:0020;4:1111;4:1111/3:0012;4:1111;3:0010"
+        C.editsAre(2, "3:0010;4:1111", 2, "3:2010;4:1111;3:0010/3:0210;4:1111;3:0010/3:0020;4:1111;4:1111/3:0012;4:1111;3:0010"
                 + "/3:0010;4:2111;4:1111/3:0010;4:1211;4:1111/3:0010;4:1121;4:1111/3:0010;4:1112;4:1111");
-        edits(2, "1:0123;2:0123;3:2222;4:3210", 3, "1:0012;3:1111;4:2100/1:0102;2:0102;4:2010/1:0120;2:0120;3:2222");
-        edits(2, "1:0000", 3, "");
-        many(2, Check.repeat("1:0000;", 5) + "1:0000", 2, 0);
-        many(2, Check.repeat("1:0000;", 5) + "1:0000", 1, 6 * 4 * 5);
+        C.editsAre(2, "1:0123;2:0123;3:2222;4:3210", 3, "1:0012;3:1111;4:2100/1:0102;2:0102;4:2010/1:0120;2:0120;3:2222");
+        C.editsAre(2, "1:0000", 3, "");
+        C.editsMany(2, Check.repeat("1:0000;", 5) + "1:0000", 2, 0);
+        C.editsMany(2, Check.repeat("1:0000;", 5) + "1:0000", 1, 6 * 4 * 5);
     }
 
     private static void netEdits() {
-        edits(3, "3:01,12", 0, "3:02,12/3:12,12/3:01,01/3:01,02");
-        edits(3, "2:01", 0, "");
-        edits(3, "3:01,12,12", 1, "3:12,12/3:01,12/3:01,12");
-        edits(3, "3:12", 2, "3:01,12/3:02,12/3:12,12/3:12,01/3:12,02/3:12,12");
-        edits(3, "3:", 2, "3:01/3:02/3:12");
-        edits(3, "3:01,12,12,02", 3, "3:12,01,12,02/3:01,12,02,12");
-        edits(3, "3:", 3, "");
-        edits(3, "3:", 1, "");
-        edits(3, "3:01", 3, "");
-        many(3, "8:01" + Check.repeat(",12", 39), 2, 0);
-        many(3, "8:01" + Check.repeat(",12", 38), 2, 40 * 28);
+        C.editsAre(3, "3:01,12", 0, "3:02,12/3:12,12/3:01,01/3:01,02");
+        C.editsAre(3, "2:01", 0, "");
+        C.editsAre(3, "3:01,12,12", 1, "3:12,12/3:01,12/3:01,12");
+        C.editsAre(3, "3:12", 2, "3:01,12/3:02,12/3:12,12/3:12,01/3:12,02/3:12,12");
+        C.editsAre(3, "3:", 2, "3:01/3:02/3:12");
+        C.editsAre(3, "3:01,12,12,02", 3, "3:12,01,12,02/3:01,12,02,12");
+        C.editsAre(3, "3:", 3, "");
+        C.editsAre(3, "3:", 1, "");
+        C.editsAre(3, "3:01", 3, "");
+        C.editsMany(3, "8:01" + Check.repeat(",12", 39), 2, 0);
+        C.editsMany(3, "8:01" + Check.repeat(",12", 38), 2, 40 * 28);
     }
 
     private static void wrongEdits() {
@@ -252,27 +241,22 @@ public final class ChangesTest {
         C.is("that was tried", tried > 0, true);
     }
 
-    private static void pairsAre(int kind, String a, String b, int due) {
-        BreedingHouse h = new BreedingHouse();
-        C.is("pairs of " + a + " and " + b, h.pairs(Check.read(h, kind, a), Check.read(h, kind, b)), due);
-    }
-
     private static void pairs() {
-        pairsAre(0, "x", "y", 1);
-        pairsAre(0, "(+ x (* 2 y))", "(@ 0 (+ s e))", 10);
-        pairsAre(0, "(@ 0 (+ s e))", "(@ 0 (+ s e))", 2 * 2 + 3 * 4);
-        pairsAre(0, "(? (< x y) 1 2)", "(? (! (= x y)) 1 2)", 5 * 5 + 1 * 2);
-        pairsAre(0, Check.repeat("(~ ", 11) + "x" + Check.repeat(")", 11), "(~ x)", 12 + 11);
-        pairsAre(1, "x", "y", 2);
-        pairsAre(1, "x ~", "y", 3);
-        pairsAre(1, "x 0 < b2 1 j1 7", "x d * y w -", 14);
-        pairsAre(2, "1:0000", "2:0000", 0);
-        pairsAre(2, "1:0000;2:0000", "3:0000;4:0000", 2);
-        pairsAre(2, "1:0000;2:0000", "3:0000", 0);
-        pairsAre(3, "3:01,12", "3:02", 3 * 2);
-        pairsAre(3, "3:", "3:", 1);
-        pairsAre(3, "3:01", "4:01", 0);
-        pairsAre(3, "3:01" + Check.repeat(",12", 39), "3:01,12", 41 * 3 - 3);
+        C.pairsMany(0, "x", "y", 1);
+        C.pairsMany(0, "(+ x (* 2 y))", "(@ 0 (+ s e))", 10);
+        C.pairsMany(0, "(@ 0 (+ s e))", "(@ 0 (+ s e))", 2 * 2 + 3 * 4);
+        C.pairsMany(0, "(? (< x y) 1 2)", "(? (! (= x y)) 1 2)", 5 * 5 + 1 * 2);
+        C.pairsMany(0, Check.repeat("(~ ", 11) + "x" + Check.repeat(")", 11), "(~ x)", 12 + 11);
+        C.pairsMany(1, "x", "y", 2);
+        C.pairsMany(1, "x ~", "y", 3);
+        C.pairsMany(1, "x 0 < b2 1 j1 7", "x d * y w -", 14);
+        C.pairsMany(2, "1:0000", "2:0000", 0);
+        C.pairsMany(2, "1:0000;2:0000", "3:0000;4:0000", 2);
+        C.pairsMany(2, "1:0000;2:0000", "3:0000", 0);
+        C.pairsMany(3, "3:01,12", "3:02", 3 * 2);
+        C.pairsMany(3, "3:", "3:", 1);
+        C.pairsMany(3, "3:01", "4:01", 0);
+        C.pairsMany(3, "3:01" + Check.repeat(",12", 39), "3:01,12", 41 * 3 - 3);
         BreedingHouse h = new BreedingHouse();
         C.is("two kinds", h.pairs(Check.tree(h, "x"), Check.code(h, "x")), 0);
         sizes();
@@ -280,7 +264,7 @@ public final class ChangesTest {
 
     private static void sizes() {
         // Of 59 nodes 30 are leaves, for which up to 2 nodes can come; for the others 4 can, too.
-        pairsAre(0, "(+ " + sum(29) + " " + sum(29) + ")", "(+ x (~ y))", 30 * 3 + 29 * 4);
+        C.pairsMany(0, "(+ " + sum(29) + " " + sum(29) + ")", "(+ x (~ y))", 30 * 3 + 29 * 4);
     }
 
     private static String sum(int size) {

@@ -115,6 +115,38 @@ final class Check {
         }
     }
 
+    /** All edits of what is read of a text, printed, are these. */
+    void editsAre(int kind, String text, int how, String due) {
+        BreedingHouse h = new BreedingHouse();
+        int b = read(h, kind, text);
+        is("edits " + how + " of " + text, edits(h, b, how), due);
+    }
+
+    void editsMany(int kind, String text, int how, int due) {
+        BreedingHouse h = new BreedingHouse();
+        is("edits " + how + " of " + text, h.edits(read(h, kind, text), how), due);
+    }
+
+    void pairsMany(int kind, String a, String b, int due) {
+        BreedingHouse h = new BreedingHouse();
+        is("pairs of " + a + " and " + b, h.pairs(read(h, kind, a), read(h, kind, b)), due);
+    }
+
+    void leastIs(String text, String due) {
+        BreedingHouse h = new BreedingHouse();
+        int b = machine(h, text);
+        int c = h.least(b);
+        is("least of " + text, print(h, c), due);
+        is("equal", h.equal(b, c), 1);
+    }
+
+    /** Numbers that aren't told are 0. */
+    void witnessIs(BreedingHouse h, int... due) {
+        for (int what = 0; what < 15; what++) {
+            is("witness(" + what + ")", h.witness(what), what < due.length ? due[what] : 0);
+        }
+    }
+
     void end() {
         System.out.println(wrong == 0 ? "all answers are as due" : wrong + " answers are not as due");
         if (wrong != 0) {

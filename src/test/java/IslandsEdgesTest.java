@@ -35,6 +35,9 @@ public final class IslandsEdgesTest {
         moved();
         movedToTheWorst();
         notMoved();
+        movedByScore();
+        kindOfMembers();
+        chosenAmongFaults();
         bestMember();
         fronts();
         oddsOfOrders();
@@ -80,14 +83,17 @@ public final class IslandsEdgesTest {
                 int code = h.compile(h.tree(size, draws.wide(h.trees(size))), 1);
                 zeros += code < 0 ? 1 : 0;
                 C.is("code", Check.print(h, k), code < 0 ? "0" : Check.print(h, code));
+                C.is("the same", code < 0 || h.same(k, code), true);
                 C.is("way", h.birth(k, 2), 2);
+                C.is("lines", h.birth(k, 7), 0);
             }
         }
         C.is("some can't be", zeros > 0, true);
     }
 
     private static void populatedMachines() {
-        C.about("Promise 34", "MACHINES with so many states: for each its OUTPUT, a DRAW of 10, then its EDGES, DRAWS of size");
+        C.about("Promise 34", "MACHINES with so many states: for each its OUTPUT, a DRAW of 10, then its EDGES, "
+                + "DRAWS of size");
         for (int size : new int[] {1, 6}) {
             BreedingHouse h = new BreedingHouse();
             Draws draws = new Draws(-5);
@@ -103,8 +109,8 @@ public final class IslandsEdgesTest {
     }
 
     private static void populatedNets() {
-        C.about("Promise 34", "NETS with so many lines and twice as many COMPARATORS: i, a DRAW of size - 1, then j, i and 1 and a DRAW of "
-                + "size - 1 - i.");
+        C.about("Promise 34", "NETS with so many lines and twice as many COMPARATORS: i, a DRAW of size - 1, then j, "
+                + "i and 1 and a DRAW of size - 1 - i.");
         for (int size : new int[] {2, 3, 8}) {
             BreedingHouse h = new BreedingHouse();
             Draws draws = new Draws(17);
@@ -136,7 +142,8 @@ public final class IslandsEdgesTest {
     }
 
     private static void wrongKinds() {
-        C.about("Promise 34", "IllegalArgumentException: kind; n isn't 1 .. 16; size isn't 1 .. 9 (TREES, CODE), 1 .. 6 (MACHINES), 2 .. 8 (NETS).");
+        C.about("Promise 34", "IllegalArgumentException: kind; n isn't 1 .. 16; size isn't 1 .. 9 (TREES, CODE), 1 "
+                + ".. 6 (MACHINES), 2 .. 8 (NETS).");
         BreedingHouse h = new BreedingHouse();
         for (int kind : new int[] {-1, 4, LEAST, MOST}) {
             C.fails("kind " + kind, Check.ARGUMENT, () -> h.populate(0, kind, 1, 2, 0));
@@ -296,7 +303,7 @@ public final class IslandsEdgesTest {
         long seed = 31L * kind + 7 * n + seen + settings[3];
         int size = 3 + kind % 3;
         for (BreedingHouse one : new BreedingHouse[] {h, hand}) {
-            someCases(one, seen, 2);
+            someCases(one, seen, Math.min(2, 24 - seen));
             for (int what = 0; what < 4; what++) {
                 one.set(1 + what, settings[what]);
             }
@@ -410,10 +417,11 @@ public final class IslandsEdgesTest {
     }
 
     private static void choiceByCases() {
-        C.about("Term 7", "only MEMBERS with the least ERROR of those that are left stay, till one is left or all cases are through (all DRAWS "
-                + "are made in any case): the one with the least PLACE.");
-        for (int seen : new int[] {0, 1, 2, 3, 8, 22}) {
+        C.about("Term 7", "only MEMBERS with the least ERROR of those that are left stay, till one is left or all "
+                + "cases are through (all DRAWS are made in any case): the one with the least PLACE.");
+        for (int seen : new int[] {0, 1, 2, 3, 8, 22, 24}) {
             bredAlike(0, 8, seen, 1, 3, 30, 1);
+            bredAlike(3, 16, seen, 1, 3, 30, 1);
             bredAlike(2, 5, seen, 0, 3, 50, 1);
         }
         bredAlike(0, 1, 5, 0, 3, 30, 1);
@@ -512,7 +520,8 @@ public final class IslandsEdgesTest {
     }
 
     private static void notMoved() {
-        C.about("Promise 38", "False, and nothing changes, if both are one ISLAND, one has no MEMBERS, or their first MEMBERS are of two KINDS.");
+        C.about("Promise 38", "False, and nothing changes, if both are one ISLAND, one has no MEMBERS, or their "
+                + "first MEMBERS are of two KINDS.");
         BreedingHouse h = new BreedingHouse();
         C.is("both without members", h.move(0, 1), false);
         for (int kind = 0; kind < 3; kind++) {
@@ -527,6 +536,65 @@ public final class IslandsEdgesTest {
             C.is("as it was", ByHand.members(h, island).toString(), "[" + 2 * island + ", " + (2 * island + 1) + "]");
         }
         C.is("none has come", h.members(3), 0);
+        BreedingHouse g = new BreedingHouse();
+        g.populate(0, 3, 3, 4, 1);
+        g.populate(0, 0, 1, 4, 1);
+        g.populate(1, 0, 2, 4, 1);
+        C.is("those that were there don't count", g.move(0, 1), true);
+        C.is("nor on the other one", g.move(1, 0), true);
+    }
+
+    private static void movedByScore() {
+        C.about("Throws", "nothing of SCORES is kept");
+        BreedingHouse h = new BreedingHouse();
+        h.populate(0, 0, 3, 1, seedOf(1, 5, 3));
+        h.populate(1, 0, 3, 1, seedOf(4, 9, 0));
+        h.add(0, 0, 0, 5, 1, false);
+        h.add(0, 0, 0, 1, 9, true);
+        C.is("the best of 1, 5, 3 comes for the worst of 4, 9, 0", h.move(0, 1), true);
+        C.is("5 for 0", ByHand.members(h, 1).toString(), "[3, 4, 1]");
+        C.is("best()", h.best(0), 1);
+        h.drop(0);
+        h.add(0, 0, 0, 2, 1, false);
+        C.is("the best of 1, 5, 3 now comes for the worst of 4, 9, 5", h.move(0, 1), true);
+        C.is("1 for 9", ByHand.members(h, 1).toString(), "[3, 0, 1]");
+        C.is("best()", h.best(0), 0);
+        C.is("front", ByHand.front(h, 1).toString(), "[0]");
+        h.drop(1);
+        C.is("without seen cases", h.best(1), 0);
+        C.is("front", ByHand.front(h, 1).toString(), "[3, 0, 1]");
+    }
+
+    private static void kindOfMembers() {
+        C.about("Term 7", "a HOW, a DRAW of 5 (of 4 for others than TREES)");
+        BreedingHouse h = new BreedingHouse();
+        h.populate(0, 2, 16, 3, 1);
+        h.populate(0, 0, 1, 3, 1);
+        h.set(1, 0);
+        h.set(3, 0);
+        for (int k = 0; k < 20; k++) {
+            h.breed(0, 20);
+        }
+        int regrown = 0;
+        for (int b = 17; b < h.births(); b++) {
+            regrown += h.birth(b, 5) == 4 ? 1 : 0;
+        }
+        C.is("members that were there don't count", regrown > 20, true);
+    }
+
+    private static void chosenAmongFaults() {
+        C.about("Term 7", "only MEMBERS with the least ERROR of those that are left stay");
+        BreedingHouse h = new BreedingHouse();
+        h.put(5);
+        h.add(0, 0, 0, 5, 1, false);
+        h.add(0, 0, 0, 0, 1, false);
+        // -1, and twice what stands at place 0: a fault at the second case, the only error that is left there if the
+        // first one comes first.
+        h.populate(0, 0, 3, 2, seedOf(28L, 1, 14, 14));
+        C.is("as drawn", Check.print(h, 0) + Check.print(h, 1) + Check.print(h, 2), "(~ 1)(# 0)(# 0)");
+        oddsAre(h, 0, 1, 2);
+        oddsAre(h, 1, 1, 2);
+        oddsAre(h, 2, 0, 1);
     }
 
     private static void bestMember() {
@@ -561,14 +629,20 @@ public final class IslandsEdgesTest {
         for (int k : new int[] {-1, 16, LEAST, MOST}) {
             C.is("front " + k, h.front(0, k), -1);
         }
-        C.about("Term 7", "FRONT: the MEMBERS of which no other one has both SCORE (SEEN) and SIZE no greater and one of them less; in the order "
-                + "of PLACES.");
+        C.about("Term 7", "FRONT: the MEMBERS of which no other one has both SCORE (SEEN) and SIZE no greater and "
+                + "one of them less; in the order of PLACES.");
         BreedingHouse g = new BreedingHouse();
         g.populate(0, 0, 4, 3, 1);
         g.populate(1, 0, 1, 1, 1);
         g.move(1, 0);
         C.is("one of lesser size and the same score", g.front(0, 0), 4);
         C.is("alone", g.front(0, 1), -1);
+        BreedingHouse first = new BreedingHouse();
+        first.populate(0, 0, 2, 1, 1);
+        first.populate(1, 0, 1, 3, 1);
+        first.move(1, 0);
+        C.is("the greater one is at the last place", ByHand.members(first, 0).toString(), "[0, 2]");
+        C.is("the first place has the lesser one", ByHand.front(first, 0).toString(), "[0]");
         for (int seed = 0; seed < 20; seed++) {
             frontIs(seed);
         }
@@ -584,19 +658,7 @@ public final class IslandsEdgesTest {
         for (int k = 0; k < 6; k++) {
             h.move(1 + k % 3, 0);
         }
-        List<Integer> due = new ArrayList<>();
-        List<Integer> members = ByHand.members(h, 0);
-        for (int b : members) {
-            boolean in = true;
-            for (int c : members) {
-                long score = h.score(c, false, 0) * h.score(b, false, 1) - h.score(b, false, 0) * h.score(c, false, 1);
-                int size = h.birth(c, 1) - h.birth(b, 1);
-                in = in && !(score <= 0 && size <= 0 && (score < 0 || size < 0));
-            }
-            if (in) {
-                due.add(b);
-            }
-        }
+        List<Integer> due = ByHand.dueFront(h, 0);
         C.is("front", ByHand.front(h, 0).toString(), due.toString());
     }
 
@@ -616,11 +678,15 @@ public final class IslandsEdgesTest {
 
     /** A seed by which a population of trees of size 1 is these leaves: 0 .. 9 constants, then x, y, z, n. */
     private static long seedOf(int... leaves) {
+        return seedOf(14L, leaves);
+    }
+
+    private static long seedOf(long trees, int... places) {
         for (long seed = 0; seed < 10_000_000; seed++) {
             Draws draws = new Draws(seed);
             boolean all = true;
-            for (int k = 0; all && k < leaves.length; k++) {
-                all = draws.wide(14) == leaves[k];
+            for (int k = 0; all && k < places.length; k++) {
+                all = draws.wide(trees) == places[k];
             }
             if (all) {
                 return seed;
@@ -630,7 +696,8 @@ public final class IslandsEdgesTest {
     }
 
     private static void oddsOfOrders() {
-        C.about("Promise 41", "of how many orders the MEMBER at a PLACE is the one (part 0), of how many (1), in lowest terms");
+        C.about("Promise 41", "of how many orders the MEMBER at a PLACE is the one (part 0), of how many (1), in "
+                + "lowest terms");
         BreedingHouse h = constants(2);
         h.populate(0, 0, 2, 1, seedOf(0, 1));
         oddsAre(h, 0, 1, 2);
@@ -664,7 +731,8 @@ public final class IslandsEdgesTest {
         for (int k = 0; k < 7; k++) {
             h.add(0, 0, 0, 0, 1, true);
         }
-        // Of wants 0 .. 5 the constant 0 is nearest to 0, 1; 3 to 2, 3; 5 to 5; and 3 and 5 are as near to 4: then the next case tells.
+        // Of wants 0 .. 5 the constant 0 is nearest to 0, 1; 3 to 2, 3; 5 to 5; and 3 and 5 are as near to 4: then the
+        // next case tells.
         oddsAre(h, 0, 1, 3);
         oddsAre(h, 1, 1, 5);
         oddsAre(h, 2, 7, 15);
@@ -686,13 +754,14 @@ public final class IslandsEdgesTest {
     }
 
     private static void distances() {
-        C.about("Promise 42", "how far their NUMBERS are, at most 1000000 each; 1000000 if one has a FAULT and the other one none or another; 0 if "
-                + "both have the same.");
+        C.about("Promise 42", "how far their NUMBERS are, at most 1000000 each; 1000000 if one has a FAULT and the "
+                + "other one none or another; 0 if both have the same.");
         BreedingHouse h = new BreedingHouse();
         int x = Check.tree(h, "x");
         int y = Check.tree(h, "y");
         C.is("without cases", h.distance(x, y), 0);
-        int[][] due = {{0, 999999, 999999}, {1000000, 0, 1000000}, {0, 1000001, 1000000}, {LEAST, MOST, 1000000}, {MOST, LEAST, 1000000},
+        int[][] due = {{0, 999999, 999999}, {1000000, 0, 1000000}, {0, 1000001, 1000000}, {LEAST, MOST, 1000000}, {MOST,
+                LEAST, 1000000},
             {LEAST, LEAST, 0}, {MOST, MOST - 1, 1}, {0, LEAST, 1000000}};
         long sum = 0;
         for (int[] one : due) {
@@ -711,7 +780,8 @@ public final class IslandsEdgesTest {
         int[] faults = {0, 1, 1, 2, 3};
         for (int a = 0; a < 5; a++) {
             for (int b = 0; b < 5; b++) {
-                C.is("faults " + faults[a] + " and " + faults[b], g.distance(births[a], births[b]), faults[a] == faults[b] ? 0 : 1000000);
+                C.is("faults " + faults[a] + " and " + faults[b], g.distance(births[a], births[b]), faults[a]
+                        == faults[b] ? 0 : 1000000);
             }
         }
         for (int none : new int[] {-1, 5, LEAST, MOST}) {
@@ -721,7 +791,8 @@ public final class IslandsEdgesTest {
     }
 
     private static void novelties() {
-        C.about("Promise 43", "The sum of the three least distances of a MEMBER from those at the other PLACES of its ISLAND");
+        C.about("Promise 43", "The sum of the three least distances of a MEMBER from those at the other PLACES of "
+                + "its ISLAND");
         BreedingHouse h = new BreedingHouse();
         h.add(0, 0, 0, 0, 1, false);
         h.populate(0, 0, 5, 1, seedOf(1, 3, 7, 8, 2));
@@ -770,6 +841,7 @@ public final class IslandsEdgesTest {
         int e = h.cross(c, d, 1);
         C.is("two lines", h.line(e), 4);
         C.is("the first of all is still of none", h.line(a), 0);
+        C.is("nor does another line count", h.line(d), 0);
         int last = e;
         while (h.births() < 600) {
             last = h.cross(last, last, 1);
@@ -781,7 +853,8 @@ public final class IslandsEdgesTest {
     }
 
     private static void forebears() {
-        C.about("Promise 45", "The greatest BIRTH that is both, or of which both come (one may come of the other one); -1 without.");
+        C.about("Promise 45", "The greatest BIRTH that is both, or of which both come (one may come of the other "
+                + "one); -1 without.");
         BreedingHouse h = new BreedingHouse();
         int a = Check.tree(h, "x");
         int b = Check.tree(h, "y");
@@ -810,7 +883,8 @@ public final class IslandsEdgesTest {
     }
 
     private static void gains() {
-        C.about("Promise 46", "The SCORE over SEEN CASES of its first PARENT less its own, in lowest terms: what stands above (part 0), below (1; above 0).");
+        C.about("Promise 46", "The SCORE over SEEN CASES of its first PARENT less its own, in lowest terms: what "
+                + "stands above (part 0), below (1; above 0).");
         BreedingHouse h = new BreedingHouse();
         int a = Check.tree(h, "5");
         int more = h.edit(a, 0, 0);
@@ -858,17 +932,19 @@ public final class IslandsEdgesTest {
     }
 
     private static void replays() {
-        C.about("Promise 47", "Whether a program of a WAY 3 or 4 comes anew of its PARENTS by HOW, the number of EDIT or PAIR, or seed. "
-                + "IllegalArgumentException: it is of another WAY.");
+        C.about("Promise 47", "Whether a program of a WAY 3 or 4 comes anew of its PARENTS by HOW, the number of "
+                + "EDIT or PAIR, or seed. IllegalArgumentException: it is of another WAY.");
         BreedingHouse h = new BreedingHouse();
         int t = Check.tree(h, "(+ x 5)");
         int m = Check.machine(h, "1:0000");
         int n = Check.net(h, "2:01");
-        int[] alike = {h.edit(t, 0, 0), h.edit(t, 0, 4), h.change(t, 0, -1), h.change(t, 4, 5), h.change(m, 3, 0), h.cross(t, t, 9), h.cross(m, m, 9)};
+        int[] alike = {h.edit(t, 0, 0), h.edit(t, 0, 4), h.change(t, 0, -1), h.change(t, 4, 5), h.change(m, 3, 0),
+                h.cross(t, t, 9), h.cross(m, m, 9)};
         for (int b : alike) {
             C.is("birth " + b, h.replay(b), true);
         }
-        int[] others = {t, h.tree(1, 0), h.search(1), h.populate(0, 0, 1, 1, 0), h.simple(t), h.minimal(t), h.compile(t, 1), h.least(m), h.clean(n)};
+        int[] others = {t, h.tree(1, 0), h.search(1), h.populate(0, 0, 1, 1, 0), h.simple(t), h.minimal(t), h.compile(t,
+                1), h.least(m), h.clean(n)};
         for (int b : others) {
             C.fails("way " + h.birth(b, 2), Check.ARGUMENT, () -> h.replay(b));
         }

@@ -114,53 +114,6 @@ public final class IslandsTest {
         return order;
     }
 
-    private static List<Integer> members(BreedingHouse h, int island) {
-        List<Integer> members = new ArrayList<>();
-        for (int k = 0; k < h.members(island); k++) {
-            members.add(h.member(island, k));
-        }
-        return members;
-    }
-
-    private static List<Integer> front(BreedingHouse h, int island) {
-        List<Integer> front = new ArrayList<>();
-        for (int k = 0; h.front(island, k) >= 0; k++) {
-            front.add(h.front(island, k));
-        }
-        return front;
-    }
-
-    private static int choice(BreedingHouse h, List<Integer> members, List<Integer> front, int choice, Draws draws) {
-        if (choice == 2) {
-            return front.get(draws.draw(front.size()));
-        }
-        if (choice == 0) {
-            int best = members.get(draws.draw(members.size()));
-            for (int k = 1; k < 3; k++) {
-                int next = members.get(draws.draw(members.size()));
-                best = h.compare(next, best) < 0 ? next : best;
-            }
-            return best;
-        }
-        int[] order = {0, 1, 2, 4, 5};
-        for (int k = 4; k >= 1; k--) {
-            int at = draws.draw(k + 1);
-            int moved = order[k];
-            order[k] = order[at];
-            order[at] = moved;
-        }
-        List<Integer> left = new ArrayList<>(members);
-        for (int k : order) {
-            int least = Integer.MAX_VALUE;
-            for (int b : left) {
-                least = Math.min(least, h.error(b, k));
-            }
-            int least1 = least;
-            left.removeIf(b -> h.error(b, k) != least1);
-        }
-        return left.get(0);
-    }
-
     /** Breeds on one island, and by hand with a second house that is told the same. */
     private static void breeding(int kind, int choice, int crossing) {
         BreedingHouse h = new BreedingHouse();
@@ -178,23 +131,13 @@ public final class IslandsTest {
         for (int k = 0; k < 9 * drawsOf(kind, size); k++) {
             draws.next();
         }
-        List<Integer> members = members(h, 0);
-        List<Integer> front = front(h, 0);
+        ByHand by = new ByHand(hand, draws);
+        by.elites = 2;
+        by.crossing = crossing;
+        by.choice = choice;
+        List<Integer> due = by.generation(ByHand.members(h, 0), ByHand.front(h, 0));
         int best = h.breed(0, 1);
-        List<Integer> due = inOrder(hand, members).subList(0, 2);
-        due = new ArrayList<>(due);
-        for (int k = 2; k < 9; k++) {
-            if (draws.draw(100) < crossing) {
-                int a = choice(hand, members, front, choice, draws);
-                int b = choice(hand, members, front, choice, draws);
-                due.add(hand.cross(a, b, draws.wide(1L << 62)));
-            } else {
-                int a = choice(hand, members, front, choice, draws);
-                int how = draws.draw(kind == 0 ? 5 : 4);
-                due.add(hand.change(a, how, draws.wide(1L << 62)));
-            }
-        }
-        C.is("members", members(h, 0).toString(), due.toString());
+        C.is("members", ByHand.members(h, 0).toString(), due.toString());
         for (int b : due) {
             C.is("child", Check.print(h, b), Check.print(hand, b));
             for (int what = 0; what < 9; what++) {
@@ -222,7 +165,7 @@ public final class IslandsTest {
         h.populate(0, 0, 16, 3, 1);
         int best = h.breed(0, 20);
         C.is("16 and 15 * 20", h.births(), 316);
-        C.is("is a member", members(h, 0).contains(best), true);
+        C.is("is a member", ByHand.members(h, 0).contains(best), true);
         h.breed(0, 18);
         C.is("270 more", h.births(), 586);
         C.fails("no room for 15", Check.STATE, () -> h.breed(0, 1));
@@ -238,9 +181,9 @@ public final class IslandsTest {
         h.add(1, 2, 3, 4, 1, false);
         h.populate(0, 0, 3, 3, 9);
         h.set(1, 4);
-        List<Integer> due = inOrder(h, members(h, 0));
+        List<Integer> due = inOrder(h, ByHand.members(h, 0));
         h.breed(0, 5);
-        C.is("all stay, in order", members(h, 0).toString(), due.toString());
+        C.is("all stay, in order", ByHand.members(h, 0).toString(), due.toString());
         C.is("none was born", h.births(), 3);
         Check.fill(h, 600);
         C.is("there is room for none", h.breed(0, 1), due.get(0));
@@ -254,14 +197,14 @@ public final class IslandsTest {
         h.populate(0, 0, 4, 3, 2);
         h.populate(1, 0, 5, 3, 3);
         h.populate(2, 1, 2, 3, 4);
-        List<Integer> before = members(h, 1);
+        List<Integer> before = ByHand.members(h, 1);
         List<Integer> order = inOrder(h, before);
         int best = h.best(0);
         C.is("moved", h.move(0, 1), true);
         before.set(before.indexOf(order.get(4)), best);
-        C.is("the worst one's place", members(h, 1).toString(), before.toString());
+        C.is("the worst one's place", ByHand.members(h, 1).toString(), before.toString());
         C.is("once more", h.move(0, 1), true);
-        List<Integer> twice = members(h, 1);
+        List<Integer> twice = ByHand.members(h, 1);
         C.is("it is there twice", twice.size(), 5);
         C.is("one island", h.move(1, 1), false);
         C.is("two kinds", h.move(0, 2), false);
@@ -306,20 +249,8 @@ public final class IslandsTest {
         cases(h);
         for (int seed = 0; seed < 12; seed++) {
             h.populate(0, seed % 4, 12, 2 + seed % 5, seed);
-            List<Integer> members = members(h, 0);
-            List<Integer> due = new ArrayList<>();
-            for (int b : members) {
-                boolean in = true;
-                for (int c : members) {
-                    long score = h.score(c, false, 0) * h.score(b, false, 1) - h.score(b, false, 0) * h.score(c, false, 1);
-                    int size = h.birth(c, 1) - h.birth(b, 1);
-                    in = in && !(score <= 0 && size <= 0 && (score < 0 || size < 0));
-                }
-                if (in) {
-                    due.add(b);
-                }
-            }
-            C.is("front", front(h, 0).toString(), due.toString());
+            List<Integer> due = ByHand.dueFront(h, 0);
+            C.is("front", ByHand.front(h, 0).toString(), due.toString());
             C.is("behind", h.front(0, due.size()), -1);
             C.is("ahead", h.front(0, -1), -1);
         }

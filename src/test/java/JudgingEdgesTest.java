@@ -30,6 +30,7 @@ public final class JudgingEdgesTest {
         usedSteps();
         errors();
         scoresInLowestTerms();
+        scoresOfWhatIsLeft();
         scoresWithoutCases();
         otherParts();
         overfits();
@@ -59,7 +60,8 @@ public final class JudgingEdgesTest {
     }
 
     private static void rows() {
-        C.about("Term 1", "A CASE has NUMBERS x, y, z, a ROW of 0 to 8 NUMBERS, a WANT (a NUMBER) and a WEIGHT 1 to 9, and is SEEN or HIDDEN.");
+        C.about("Term 1", "A CASE has NUMBERS x, y, z, a ROW of 0 to 8 NUMBERS, a WANT (a NUMBER) and a WEIGHT 1 to "
+                + "9, and is SEEN or HIDDEN.");
         BreedingHouse h = new BreedingHouse();
         for (int length = 0; length <= 8; length++) {
             for (int k = 0; k < length; k++) {
@@ -80,7 +82,8 @@ public final class JudgingEdgesTest {
     }
 
     private static void rowTooLong() {
-        C.about("Promise 14", "A number comes behind the ROW that is collected: how many it has; -1, and none comes, if it has 8.");
+        C.about("Promise 14", "A number comes behind the ROW that is collected: how many it has; -1, and none comes, "
+                + "if it has 8.");
         BreedingHouse h = new BreedingHouse();
         for (int k = 1; k <= 8; k++) {
             C.is("put", h.put(10 * k), k);
@@ -204,7 +207,8 @@ public final class JudgingEdgesTest {
         BreedingHouse h = new BreedingHouse();
         String[] trees = {"(+ x y)", "(- x y)", "(* x y)"};
         String[] codes = {"x y +", "x y -", "x y *"};
-        int[][] due = {{MOST, 1, LEAST}, {LEAST, 1, MOST}, {MOST, 2, -2}, {LEAST, -1, MOST}, {MOST, -1, LEAST}, {LEAST, -1, LEAST}};
+        int[][] due = {{MOST, 1, LEAST}, {LEAST, 1, MOST}, {MOST, 2, -2}, {LEAST, -1, MOST}, {MOST, -1, LEAST}, {LEAST,
+                -1, LEAST}};
         for (int k = 0; k < 6; k++) {
             tree(h, trees[k % 3], due[k][0], due[k][1], 0, due[k][2]);
             code(h, codes[k % 3], due[k][0], due[k][1], 0, due[k][2]);
@@ -230,7 +234,8 @@ public final class JudgingEdgesTest {
         code(h, "x y %", LEAST, -1, 0, 0);
         tree(h, "(/ x y)", MOST, -1, 0, -MOST);
         C.about("Term 2", "13 / (towards 0), 14 % (what that leaves)");
-        int[][] quotients = {{7, 2, 3, 1}, {-7, 2, -3, -1}, {7, -2, -3, 1}, {-7, -2, 3, -1}, {1, 2, 0, 1}, {-1, 2, 0, -1}, {LEAST, MOST, -1, -1}};
+        int[][] quotients = {{7, 2, 3, 1}, {-7, 2, -3, -1}, {7, -2, -3, 1}, {-7, -2, 3, -1}, {1, 2, 0, 1}, {-1, 2, 0,
+                -1}, {LEAST, MOST, -1, -1}};
         for (int[] q : quotients) {
             tree(h, "(/ x y)", q[0], q[1], 0, q[2]);
             tree(h, "(% x y)", q[0], q[1], 0, q[3]);
@@ -286,7 +291,8 @@ public final class JudgingEdgesTest {
     }
 
     private static void limitAtFirst() {
-        C.about("Term 1", "3 more STEPS than the LIMIT (at first 200; the STEP that would be one too many isn't done).");
+        C.about("Term 1", "3 more STEPS than the LIMIT (at first 200; the STEP that would be one too many isn't "
+                + "done).");
         BreedingHouse h = new BreedingHouse();
         Check.put(h, 1, 1, 1, 1, 1, 1, 1, 1);
         int just = Check.tree(h, "(+ " + fold(24, "e") + " (+ 1 1))");
@@ -321,8 +327,8 @@ public final class JudgingEdgesTest {
     }
 
     private static void foldsOfRows() {
-        C.about("Term 2", "FOLD: s is the first part; then for each number of the ROW, from the first on, e is that, and s becomes the "
-                + "second part, worked anew; FOLD is s then.");
+        C.about("Term 2", "FOLD: s is the first part; then for each number of the ROW, from the first on, e is that, "
+                + "and s becomes the second part, worked anew; FOLD is s then.");
         BreedingHouse h = new BreedingHouse();
         tree(h, "(@ x (/ 1 0))", 7, 0, 0, 7, 2);
         h.put(5);
@@ -360,7 +366,8 @@ public final class JudgingEdgesTest {
         BreedingHouse h = new BreedingHouse();
         int m = Check.machine(h, "9:0123;1:1111;2:2222;3:3333");
         asked(h, m, 1, 2, 3, 0, 9, 1);
-        int[][] classes = {{0, 9}, {1, 1}, {2, 2}, {3, 3}, {4, 9}, {7, 3}, {-1, 3}, {-2, 2}, {-3, 1}, {-4, 9}, {-5, 3}, {LEAST, 9}, {MOST, 3}};
+        int[][] classes = {{0, 9}, {1, 1}, {2, 2}, {3, 3}, {4, 9}, {7, 3}, {-1, 3}, {-2, 2}, {-3, 1}, {-4, 9}, {-5, 3},
+                {LEAST, 9}, {MOST, 3}};
         for (int[] one : classes) {
             h.put(one[0]);
             int k = h.add(0, 0, 0, 0, 1, false);
@@ -495,9 +502,12 @@ public final class JudgingEdgesTest {
         C.about("Term 5", "how far its NUMBER is from WANT, at most 1000000; 2000000 with a FAULT.");
         BreedingHouse h = new BreedingHouse();
         int x = Check.tree(h, "x");
-        int[][] due = {{0, 0, 0}, {0, 1, 1}, {1, 0, 1}, {0, 999999, 999999}, {999999, 0, 999999}, {0, 1000000, 1000000}, {-1, 999999, 1000000},
-            {0, 1000001, 1000000}, {1000001, 0, 1000000}, {LEAST, MOST, 1000000}, {MOST, LEAST, 1000000}, {LEAST, 0, 1000000},
-            {MOST, -1, 1000000}, {MOST, MOST - 3, 3}, {LEAST, LEAST + 4, 4}, {LEAST, LEAST, 0}, {1000000000, -2000000000, 1000000}};
+        int[][] due = {{0, 0, 0}, {0, 1, 1}, {1, 0, 1}, {0, 999999, 999999}, {999999, 0, 999999}, {0, 1000000, 1000000},
+                {-1, 999999, 1000000},
+            {0, 1000001, 1000000}, {1000001, 0, 1000000}, {LEAST, MOST, 1000000}, {MOST, LEAST, 1000000}, {LEAST, 0,
+            1000000},
+            {MOST, -1, 1000000}, {MOST, MOST - 3, 3}, {LEAST, LEAST + 4, 4}, {LEAST, LEAST, 0}, {1000000000,
+            -2000000000, 1000000}};
         for (int[] one : due) {
             int k = h.add(one[0], 0, 0, one[1], 1, false);
             C.is(one[0] + " for " + one[1], h.error(x, k), one[2]);
@@ -546,6 +556,24 @@ public final class JudgingEdgesTest {
         scoreIs(full, y, true, 1500000, 1);
     }
 
+    private static void scoresOfWhatIsLeft() {
+        C.about("Throws", "nothing of SCORES is kept");
+        BreedingHouse h = new BreedingHouse();
+        int x = Check.tree(h, "x");
+        h.add(3, 0, 0, 4, 2, false);
+        h.add(3, 0, 0, 9, 5, false);
+        h.add(3, 0, 0, 5, 7, true);
+        scoreIs(h, x, false, 32, 7);
+        h.drop(2);
+        scoreIs(h, x, true, 0, 1);
+        h.drop(1);
+        scoreIs(h, x, false, 1, 1);
+        C.is("hits", h.hits(x, false), 0);
+        C.is("distance", h.distance(x, Check.tree(h, "y")), 3);
+        h.drop(0);
+        scoreIs(h, x, false, 0, 1);
+    }
+
     private static void scoresWithoutCases() {
         C.about("Term 5", "(0 through 1 without such)");
         BreedingHouse h = new BreedingHouse();
@@ -580,7 +608,8 @@ public final class JudgingEdgesTest {
     }
 
     private static void overfits() {
-        C.about("Promise 25", "The SCORE over HIDDEN ones less that over SEEN ones, in lowest terms, below it above 0: likewise.");
+        C.about("Promise 25", "The SCORE over HIDDEN ones less that over SEEN ones, in lowest terms, below it above "
+                + "0: likewise.");
         BreedingHouse h = new BreedingHouse();
         int x = Check.tree(h, "x");
         overfitIs(h, x, 0, 1);
@@ -647,8 +676,8 @@ public final class JudgingEdgesTest {
     }
 
     private static void settings() {
-        C.about("Term 7", "SETTINGS: 0 LIMIT 10 .. 2000 (200), 1 ELITES 0 .. 4 (1), 2 TOURNAMENT 1 .. 5 (3), 3 CROSSING 0 .. 100 (30), "
-                + "4 CHOICE 0 .. 2 (0).");
+        C.about("Term 7", "SETTINGS: 0 LIMIT 10 .. 2000 (200), 1 ELITES 0 .. 4 (1), 2 TOURNAMENT 1 .. 5 (3), 3 "
+                + "CROSSING 0 .. 100 (30), 4 CHOICE 0 .. 2 (0).");
         int[] least = {10, 0, 1, 0, 0};
         int[] most = {2000, 4, 5, 100, 2};
         int[] first = {200, 1, 3, 30, 0};

@@ -21,6 +21,10 @@ public final class ProgramsEdgesTest {
         noSuchItem();
         anotherItemWhat();
         same();
+        editsAsTheirTexts();
+        crossesAsTheirTexts();
+        othersAsTheirTexts();
+        roomForTheLast();
         sizesOfTrees();
         placesInTheOrder();
         noSuchTree();
@@ -76,8 +80,9 @@ public final class ProgramsEdgesTest {
     }
 
     private static void ways() {
-        C.about("Term 1", "A BIRTH has a WAY: 0 read(), 1 tree() or search(), 2 populate(), 3 edit(), change() or breed() by "
-                + "change, 4 cross() or breed() by cross, 5 simple(), 6 minimal(), 7 compile(), least(), clean()");
+        C.about("Term 1", "A BIRTH has a WAY: 0 read(), 1 tree() or search(), 2 populate(), 3 edit(), change() or "
+                + "breed() by change, 4 cross() or breed() by cross, 5 simple(), 6 minimal(), 7 compile(), least(), "
+                + "clean()");
         BreedingHouse h = new BreedingHouse();
         int t = Check.tree(h, "(+ x 5)");
         int m = Check.machine(h, "1:0000");
@@ -123,7 +128,8 @@ public final class ProgramsEdgesTest {
         int c = Check.code(h, "x");
         int m = Check.machine(h, "1:0000");
         int n = Check.net(h, "2:01");
-        int[][] made = {{h.simple(t), t}, {h.minimal(c), c}, {h.compile(t, 1), t}, {h.compile(c, 0), c}, {h.least(m), m},
+        int[][] made = {{h.simple(t), t}, {h.minimal(c), c}, {h.compile(t, 1), t}, {h.compile(c, 0), c}, {h.least(m),
+                m},
             {h.clean(n), n}, {h.edit(t, 1, 0), t}, {h.change(t, 0, 0), t}};
         for (int[] one : made) {
             C.is("the first", h.birth(one[0], 3), one[1]);
@@ -142,8 +148,9 @@ public final class ProgramsEdgesTest {
         C.is("how 4", h.birth(h.change(t, 4, 0), 5), 4);
         int m = Check.machine(h, "1:0000");
         C.is("also if there was no edit", h.birth(h.change(m, 3, 0), 5), 3);
-        int[] others = {t, h.tree(1, 0), h.populate(0, 0, 1, 1, 0), h.cross(t, t, 0), h.simple(t), h.minimal(t), h.compile(t, 1),
-            h.least(m)};
+        int[] others = {t, h.tree(1, 0), h.search(1), h.populate(0, 0, 1, 1, 0), h.cross(t, t, 0), h.simple(t),
+                h.minimal(t), h.compile(t, 1),
+            h.least(m), h.clean(Check.net(h, "2:"))};
         for (int b : others) {
             C.is("way " + h.birth(b, 2), h.birth(b, 5), -1);
         }
@@ -161,7 +168,9 @@ public final class ProgramsEdgesTest {
         C.is("no edit was", h.birth(h.change(Check.tree(h, "x"), 3, 9), 6), -1);
         int m = Check.machine(h, "1:0000");
         C.is("no pair was", h.birth(h.cross(m, m, 9), 6), -1);
-        int[] others = {t, h.tree(1, 0), h.populate(0, 0, 1, 1, 0), h.simple(t), h.minimal(t), h.compile(t, 1), h.least(m)};
+        int[] others = {t, h.tree(1, 0), h.search(1), h.populate(0, 0, 1, 1, 0), h.simple(t), h.minimal(t), h.compile(t,
+                1), h.least(m),
+            h.clean(Check.net(h, "2:"))};
         for (int b : others) {
             C.is("way " + h.birth(b, 2), h.birth(b, 6), -1);
         }
@@ -214,7 +223,8 @@ public final class ProgramsEdgesTest {
             C.is("change without edits", h.seed(h.change(m, 1, seed)), seed);
             C.is("cross without pairs", h.seed(h.cross(m, m, seed)), seed);
         }
-        int[] others = {t, h.tree(1, 0), h.search(1), h.populate(0, 0, 1, 1, 77), h.edit(t, 0, 0), h.simple(t), h.minimal(t),
+        int[] others = {t, h.tree(1, 0), h.search(1), h.populate(0, 0, 1, 1, 77), h.edit(t, 0, 0), h.simple(t),
+                h.minimal(t),
             h.compile(t, 1), h.least(m), h.clean(Check.net(h, "2:"))};
         for (int b : others) {
             C.is("way " + h.birth(b, 2), h.seed(b), 0);
@@ -239,8 +249,8 @@ public final class ProgramsEdgesTest {
     }
 
     private static void itemsOfAll() {
-        C.about("Promise 9", "what 0: SORT, OUTPUT, i; 1: a CONSTANT'S or PUSH'S NUMBER, a distance (0 of others), the EDGE of "
-                + "CLASS 0, j; 2 to 4: the other EDGES (0 of others).");
+        C.about("Promise 9", "what 0: SORT, OUTPUT, i; 1: a CONSTANT'S or PUSH'S NUMBER, a distance (0 of others), "
+                + "the EDGE of CLASS 0, j; 2 to 4: the other EDGES (0 of others).");
         BreedingHouse h = new BreedingHouse();
         int t = Check.tree(h, "(+ -99 n)");
         itemIs(h, t, 0, 10, 0, 0, 0, 0);
@@ -262,7 +272,8 @@ public final class ProgramsEdgesTest {
     private static void noSuchItem() {
         C.about("Promise 9", "IndexOutOfBoundsException: also no such i.");
         BreedingHouse h = new BreedingHouse();
-        int[] births = {Check.tree(h, Trees.ofSize(60)), Check.code(h, "x"), Check.machine(h, "1:0001;2:0000"), Check.net(h, "2:01"),
+        int[] births = {Check.tree(h, Trees.ofSize(60)), Check.code(h, "x"), Check.machine(h, "1:0001;2:0000"),
+                Check.net(h, "2:01"),
             Check.net(h, "2:")};
         int[] sizes = {60, 1, 2, 1, 0};
         for (int k = 0; k < 5; k++) {
@@ -294,8 +305,10 @@ public final class ProgramsEdgesTest {
     private static void same() {
         C.about("Promise 10", "Whether both are the same: KIND, lines, and all in them.");
         BreedingHouse h = new BreedingHouse();
-        String[][] texts = {{"x", "y", "1", "0", "(~ x)", "(# x)", "(+ x 1)", "(+ x 2)", "(+ 1 x)"}, {"x", "1", "x ~", "x j0", "x x b1 ~"},
-            {"1:0000", "2:0000", "1:0000;1:0000", "1:0001;1:0000", "1:0000;1:0001"}, {"2:", "3:", "2:01", "3:01", "3:02", "2:01,01"}};
+        String[][] texts = {{"x", "y", "1", "0", "(~ x)", "(# x)", "(+ x 1)", "(+ x 2)", "(+ 1 x)"}, {"x", "1", "x ~",
+                "x j0", "x x b1 ~"},
+            {"1:0000", "2:0000", "1:0000;1:0000", "1:0001;1:0000", "1:0000;1:0001"}, {"2:", "3:", "2:01", "3:01",
+            "3:02", "2:01,01"}};
         int many = 0;
         for (int kind = 0; kind < 4; kind++) {
             for (String text : texts[kind]) {
@@ -320,6 +333,123 @@ public final class ProgramsEdgesTest {
         C.fails("no birth", Check.INDEX, () -> h.same(0, h.births()));
         C.fails("no birth", Check.INDEX, () -> h.same(-1, 0));
         C.fails("no birth", Check.INDEX, () -> h.same(0, -1));
+    }
+
+    /** A birth is the same as what is read of its text: nothing else is in it. */
+    private static void asItsText(BreedingHouse h, int b) {
+        int again = Check.read(h, h.birth(b, 0), Check.print(h, b));
+        C.is(Check.print(h, b) + " of way " + h.birth(b, 2), h.same(b, again), true);
+        C.is("lines of " + Check.print(h, b), h.birth(b, 7), h.birth(again, 7));
+        for (int i = 0; i < h.birth(b, 1); i++) {
+            for (int what = 0; what < 5; what++) {
+                C.is("item of " + Check.print(h, b), h.item(b, i, what), h.item(again, i, what));
+            }
+        }
+    }
+
+    private static final String[][] TEXTS = {{"5", "(? (! (< x 1)) (@ 2 (+ 3 s)) (~ (# y)))", "(+ 1 (* x (- 9 z)))",
+            "(? (| (< x y) (& (= z 1) (< 1 n))) 1 2)"},
+        {"5", "x x b2 ~ ~", "x 3 < b4 y 4 * j1 7", "x d * y w - # n % o 7"},
+        {"5:0000", "1:0121;2:1111;3:2010", "4:1111;5:2222;6:0012", "1:0123;2:3210;3:1111;4:0000;5:4321"}, {"2:01",
+        "4:01,12,23,03", "3:"}};
+
+    private static void editsAsTheirTexts() {
+        C.about("Promise 10", "KIND, lines, and all in them");
+        for (int kind = 0; kind < 4; kind++) {
+            for (String text : TEXTS[kind]) {
+                for (int how = 0; how < 4; how++) {
+                    BreedingHouse h = new BreedingHouse();
+                    int b = Check.read(h, kind, text);
+                    C.is(text, b, 0);
+                    int many = h.edits(b, how);
+                    for (int i = 0; i < many; i++) {
+                        asItsText(h, h.edit(b, how, i));
+                    }
+                }
+            }
+        }
+    }
+
+    private static void crossesAsTheirTexts() {
+        C.about("Promise 10", "KIND, lines, and all in them");
+        for (int kind = 0; kind < 4; kind++) {
+            for (int k = 0; k < TEXTS[kind].length; k++) {
+                BreedingHouse h = new BreedingHouse();
+                int a = Check.read(h, kind, TEXTS[kind][k]);
+                int b = Check.read(h, kind, TEXTS[kind][(k + 1) % TEXTS[kind].length]);
+                for (long seed = 0; seed < 40; seed++) {
+                    asItsText(h, h.cross(a, b, seed * 0x9E3779B97F4A7C15L));
+                    asItsText(h, h.change(a, kind == 0 ? 4 : 3, seed * 0x9E3779B97F4A7C15L));
+                }
+            }
+        }
+    }
+
+    private static void othersAsTheirTexts() {
+        C.about("Promise 10", "KIND, lines, and all in them");
+        for (int kind = 0; kind < 4; kind++) {
+            BreedingHouse h = new BreedingHouse();
+            for (String text : TEXTS[kind]) {
+                asItsText(h, h.minimal(Check.read(h, kind, text)));
+            }
+            for (int size = 2; size <= 6; size++) {
+                int first = h.populate(0, kind, 16, size, size);
+                for (int k = 0; k < 16; k++) {
+                    asItsText(h, first + k);
+                }
+            }
+        }
+        BreedingHouse h = new BreedingHouse();
+        for (String text : TEXTS[0]) {
+            asItsText(h, h.simple(Check.tree(h, text)));
+        }
+        asItsText(h, h.simple(Check.tree(h, "(? (! (< x y)) (+ 1 (* z 0)) 2)")));
+        asItsText(h, h.compile(Check.tree(h, "(? (| (! (< x 1)) (& (= y 2) (< z 3))) (~ (# 4)) (/ x (% y (* z (- n "
+                + "5)))))"), 1));
+        asItsText(h, h.compile(Check.code(h, "x 1 < 2 y = + z ~ # * d -"), 0));
+        asItsText(h, h.compile(Check.code(h, "7 3 w -"), 0));
+        for (String text : TEXTS[2]) {
+            asItsText(h, h.least(Check.machine(h, text)));
+        }
+        for (String text : TEXTS[3]) {
+            asItsText(h, h.clean(Check.net(h, text)));
+        }
+        asItsText(h, h.tree(12, 77777777777L));
+        h.add(1, 2, 3, 4, 1, false);
+        asItsText(h, h.search(5));
+    }
+
+    private static void roomForTheLast() {
+        C.about("Term 1", "at most 600");
+        for (int maker = 0; maker < 12; maker++) {
+            BreedingHouse h = new BreedingHouse();
+            Check.tree(h, "(+ x 5)");
+            Check.code(h, "x 5 +");
+            Check.machine(h, "1:0001;2:0000");
+            Check.net(h, "3:01,12");
+            Check.type(h, "y");
+            Check.fill(h, 599);
+            int m = maker;
+            C.is("maker " + m + " makes the 600th", made(h, m), 599);
+            C.fails("maker " + m + " makes no 601st", Check.STATE, () -> made(h, m));
+        }
+    }
+
+    private static int made(BreedingHouse h, int maker) {
+        switch (maker) {
+            case 0: return h.read(0);
+            case 1: return h.tree(1, 0);
+            case 2: return h.edit(0, 0, 0);
+            case 3: return h.change(0, 1, 5);
+            case 4: return h.cross(3, 3, 5);
+            case 5: return h.populate(0, 3, 1, 2, 5);
+            case 6: return h.search(1);
+            case 7: return h.simple(0);
+            case 8: return h.minimal(2);
+            case 9: return h.compile(1, 0);
+            case 10: return h.least(2);
+            default: return h.clean(3);
+        }
     }
 
     private static void sizesOfTrees() {
@@ -347,6 +477,10 @@ public final class ProgramsEdgesTest {
             C.is("all others are ahead of the last", h.place(Check.tree(h, last[size - 1])), many - 1);
         }
         C.is("the first of 12", Check.print(h, h.tree(12, 0)), Trees.chain(12).replace('x', '0'));
+        int seventh = h.tree(12, 6);
+        C.is("the seventh of 12", Check.print(h, seventh), Trees.chain(12).replace('x', '6'));
+        C.is("it has 12 nodes", h.birth(seventh, 1), 12);
+        C.is("it is 12 deep", h.birth(seventh, 8), 12);
         C.is("the last of 12", h.place(h.tree(12, h.trees(12) - 1)), h.trees(12) - 1);
     }
 

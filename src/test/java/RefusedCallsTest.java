@@ -16,8 +16,8 @@ public final class RefusedCallsTest {
     private static final List<Refused> CALLS = new ArrayList<>();
 
     public static void main(String[] args) {
-        C.about("Throws", "IndexOutOfBoundsException: no such BIRTH, CASE, ISLAND, MEMBER, EDIT; IllegalArgumentException: as told; "
-                + "IllegalStateException: there is no room, or as told.");
+        C.about("Throws", "IndexOutOfBoundsException: no such BIRTH, CASE, ISLAND, MEMBER, EDIT; "
+                + "IllegalArgumentException: as told; IllegalStateException: there is no room, or as told.");
         noSuchBirth();
         noSuchOther();
         asTold();
@@ -30,7 +30,8 @@ public final class RefusedCallsTest {
         noRoom();
         tryAll(true);
         CALLS.clear();
-        C.about("Throws", "Of several the one that stands first behind \"throws\" is thrown; a call that throws changes nothing.");
+        C.about("Throws", "Of several the one that stands first behind \"throws\" is thrown; a call that throws "
+                + "changes nothing.");
         firstOfTwo();
         tryAll(false);
         firstOfAll();

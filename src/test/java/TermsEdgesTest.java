@@ -16,6 +16,7 @@ public final class TermsEdgesTest {
         wholeIsANumber();
         steps();
         notAll();
+        deepTrees();
         truths();
         sortsOfInstructions();
         pileIsEmptyAtFirst();
@@ -77,7 +78,8 @@ public final class TermsEdgesTest {
     }
 
     private static void kinds() {
-        C.about("Term 1", "A PROGRAM has a KIND: 0 TREE, 1 CODE, 2 MACHINE, 3 NET; its SIZE is how many nodes, instructions, states, comparators it has.");
+        C.about("Term 1", "A PROGRAM has a KIND: 0 TREE, 1 CODE, 2 MACHINE, 3 NET; its SIZE is how many nodes, "
+                + "instructions, states, comparators it has.");
         String[] texts = {"(+ x 1)", "x ~", "1:0000;2:0000;3:0000;4:0000", "8:01,23,45,67,07"};
         int[] sizes = {3, 2, 4, 5};
         BreedingHouse h = new BreedingHouse();
@@ -89,7 +91,8 @@ public final class TermsEdgesTest {
     }
 
     private static void numbersOfNodes() {
-        C.about("Term 2", "NODES are numbered from 0: the whole, then its first part with all in it, then the second, the third.");
+        C.about("Term 2", "NODES are numbered from 0: the whole, then its first part with all in it, then the "
+                + "second, the third.");
         BreedingHouse h = new BreedingHouse();
         int b = Check.tree(h, "(? (< (~ x) 11) (+ 12 (# 13)) (* 14 15))");
         int[] sorts = {20, 15, 7, 1, 0, 10, 0, 8, 0, 12, 0, 0};
@@ -129,7 +132,8 @@ public final class TermsEdgesTest {
     private static void sortsOfNodes() {
         C.about("Term 2", "Each is a NUMBER or a TRUTH and has a SORT");
         BreedingHouse h = new BreedingHouse();
-        String[] numbers = {"0", "x", "y", "z", "n", "", "", "(~ x)", "(# x)", "", "(+ x x)", "(- x x)", "(* x x)", "(/ x x)", "(% x x)", "", "", "", "",
+        String[] numbers = {"0", "x", "y", "z", "n", "", "", "(~ x)", "(# x)", "", "(+ x x)", "(- x x)", "(* x x)",
+                "(/ x x)", "(% x x)", "", "", "", "",
             "(@ x x)", "(? (< x x) x x)"};
         for (int sort = 0; sort < 21; sort++) {
             if (!numbers[sort].isEmpty()) {
@@ -148,13 +152,15 @@ public final class TermsEdgesTest {
     private static void wholeIsANumber() {
         C.about("Term 2", "the whole is a NUMBER");
         BreedingHouse h = new BreedingHouse();
-        for (String truth : new String[] {"(< x y)", "(= x y)", "(! (< x y))", "(& (< x y) (< x y))", "(| (< x y) (< x y))"}) {
+        for (String truth : new String[] {"(< x y)", "(= x y)", "(! (< x y))", "(& (< x y) (< x y))",
+                "(| (< x y) (< x y))"}) {
             C.is(truth, Check.tree(h, truth), -1 - 1);
         }
     }
 
     private static void steps() {
-        C.about("Term 2", "A NODE is a STEP when its turn comes, ahead of its parts; these are worked from left to right, then itself");
+        C.about("Term 2", "A NODE is a STEP when its turn comes, ahead of its parts; these are worked from left to "
+                + "right, then itself");
         BreedingHouse h = new BreedingHouse();
         asked(h, Check.tree(h, "x"), 5, 0, 0, 5, 1);
         asked(h, Check.tree(h, "(# (# (# 0)))"), 5, 0, 2, 0, 4);
@@ -168,8 +174,8 @@ public final class TermsEdgesTest {
     }
 
     private static void notAll() {
-        C.about("Term 2", "but of & the second part only if the first is true, of | only if it is false, of ? the second part if the first is true, "
-                + "else the third");
+        C.about("Term 2", "but of & the second part only if the first is true, of | only if it is false, of ? the "
+                + "second part if the first is true, else the third");
         BreedingHouse h = new BreedingHouse();
         String fault = "(= (/ 1 0) 1)";
         int and = Check.tree(h, "(? (& (< x 1) " + fault + ") 7 8)");
@@ -186,13 +192,37 @@ public final class TermsEdgesTest {
         asked(h, third, 1, 0, 1, 0, 7);
     }
 
+    private static void deepTrees() {
+        C.about("Term 2", "each at most 12 deep (the whole is 1 deep)");
+        BreedingHouse h = new BreedingHouse();
+        asked(h, Check.tree(h, Trees.chain(12)), 7, 0, 0, -7, 12);
+        asked(h, Check.tree(h, Check.repeat("(+ 1 ", 11) + "x" + Check.repeat(")", 11)), 7, 0, 0, 18, 23);
+        asked(h, Check.tree(h, Check.repeat("(+ ", 11) + "x" + Check.repeat(" 2)", 11)), 7, 0, 0, 29, 23);
+        asked(h, Check.tree(h, Check.repeat("(? (= 1 2) 3 ", 10) + "(~ x)" + Check.repeat(")", 10)), 7, 0, 0, -7, 42);
+        asked(h, Check.tree(h, Check.repeat("(? (= 1 1) ", 10) + "(~ x)" + Check.repeat(" 3)", 10)), 7, 0, 0, -7, 42);
+        asked(h, Check.tree(h, "(? " + Check.repeat("(! ", 9) + "(= 1 1)" + Check.repeat(")", 9) + " 3 x)"), 7, 0, 0, 7,
+                14);
+        asked(h, Check.tree(h, "(? " + Check.repeat("(& (= 1 1) ", 9) + "(= 1 1)" + Check.repeat(")", 9) + " x 3)"), 7,
+                0, 0, 7, 41);
+        asked(h, Check.tree(h, "(? " + Check.repeat("(| (= 1 2) ", 9) + "(= 1 1)" + Check.repeat(")", 9) + " x 3)"), 7,
+                0, 0, 7, 41);
+        Check.put(h, 5);
+        asked(h, Check.tree(h, Check.repeat("(@ ", 10) + "(~ x)" + Check.repeat(" (+ s e))", 10)), 7, 0, 0, 43, 42);
+        asked(h, Check.tree(h, "(@ 5 " + Check.repeat("(- 1 ", 10) + "e" + Check.repeat(")", 10) + ")"), 7, 0, 0, 5,
+                23);
+        for (int b = 0; b < h.births(); b++) {
+            C.is("12 deep", h.birth(b, 8), 12);
+        }
+    }
+
     private static void truths() {
         C.about("Term 2", "15 < (below), 16 = : TRUTHS of two NUMBERS; 17 & (and), 18 | (or): TRUTHS of two");
         BreedingHouse h = new BreedingHouse();
         int below = Check.tree(h, "(? (< x y) 1 0)");
         int same = Check.tree(h, "(? (= x y) 1 0)");
         int not = Check.tree(h, "(? (! (< x y)) 1 0)");
-        int[][] pairs = {{0, 0}, {0, 1}, {1, 0}, {LEAST, MOST}, {MOST, LEAST}, {MOST, MOST}, {LEAST, LEAST}, {-1, 0}, {MOST - 1, MOST}};
+        int[][] pairs = {{0, 0}, {0, 1}, {1, 0}, {LEAST, MOST}, {MOST, LEAST}, {MOST, MOST}, {LEAST, LEAST}, {-1, 0},
+                {MOST - 1, MOST}};
         for (int[] p : pairs) {
             h.ask(below, p[0], p[1], 0);
             C.is("below", h.value(), p[0] < p[1] ? 1 : 0);
@@ -214,7 +244,8 @@ public final class TermsEdgesTest {
     private static void sortsOfInstructions() {
         C.about("Term 3", "with SORTS: 0 PUSH");
         BreedingHouse h = new BreedingHouse();
-        String[] codes = {"5", "x", "y", "z", "n", "x ~", "x #", "x x +", "x x -", "x x *", "x x /", "x x %", "x x <", "x x =", "x d +",
+        String[] codes = {"5", "x", "y", "z", "n", "x ~", "x #", "x x +", "x x -", "x x *", "x x /", "x x %", "x x <",
+                "x x =", "x d +",
             "x y w +", "x y o", "x j0", "x y b0"};
         int[] at = {0, 0, 0, 0, 0, 1, 1, 2, 2, 2, 2, 2, 2, 2, 1, 2, 2, 1, 2};
         for (int sort = 0; sort < 19; sort++) {
@@ -256,14 +287,15 @@ public final class TermsEdgesTest {
         C.is("60 instructions", h.birth(j, 1), 60);
         asked(h, j, 5, 1, 0, 5, 4);
         asked(h, j, 5, 0, 0, 5, 3 + 56);
-        int odd = Check.code(h, "x y b1 j55" + Check.repeat(" ~", 55) + " ~");
-        asked(h, odd, 5, 1, 0, -5, 5);
+        int less = Check.code(h, "x y b1 j55" + Check.repeat(" ~", 55) + " ~");
+        asked(h, less, 5, 1, 0, -5, 5);
         int one = Check.code(h, "x y b2 ~ j1 ~ ~");
         asked(h, one, 5, 1, 0, 5, 6);
     }
 
     private static void sameHeight() {
-        C.about("Term 3", "each instruction is reached by some way, each with the same height of the pile by all ways that lead there");
+        C.about("Term 3", "each instruction is reached by some way, each with the same height of the pile by all "
+                + "ways that lead there");
         BreedingHouse h = new BreedingHouse();
         C.is("both ways leave 1", Check.code(h, "x b2 1 j1 2"), 0);
         C.is("both ways leave 2", Check.code(h, "x y b2 1 j1 2 +"), 1);
@@ -290,8 +322,10 @@ public final class TermsEdgesTest {
         for (int many = 1; many <= 6; many++) {
             String text = "1:0000" + Check.repeat(";1:0000", many - 1);
             C.is("states", h.birth(Check.machine(h, text), 1), many);
-            C.is("the last state can be led to", Check.machine(h, text.substring(0, text.length() - 1) + (many - 1)) >= 0, true);
-            C.is("the next one can't", Check.machine(h, text.substring(0, text.length() - 1) + many), -1 - (text.length() - 1));
+            C.is("the last state can be led to", Check.machine(h, text.substring(0, text.length() - 1)
+                    + (many - 1)) >= 0, true);
+            C.is("the next one can't", Check.machine(h, text.substring(0, text.length() - 1) + many),
+                    -1 - (text.length() - 1));
         }
         C.is("none", Check.machine(h, ""), -1);
         C.is("seven", Check.machine(h, "1:0000" + Check.repeat(";1:0000", 6)), -1 - 42);
@@ -354,7 +388,8 @@ public final class TermsEdgesTest {
     }
 
     private static void better() {
-        C.about("Term 5", "BETTER is a program with a lesser SCORE over SEEN ones; of two alike that of lesser SIZE; then the lesser BIRTH.");
+        C.about("Term 5", "BETTER is a program with a lesser SCORE over SEEN ones; of two alike that of lesser SIZE; "
+                + "then the lesser BIRTH.");
         BreedingHouse h = new BreedingHouse();
         int far = Check.tree(h, "3");
         int near = Check.tree(h, "(+ 1 1)");
@@ -370,12 +405,14 @@ public final class TermsEdgesTest {
     }
 
     private static void streams() {
-        C.about("Term 5", "for each DRAW s becomes s * 6364136223846793005 + 1442695040888963407 (a long that wraps), and the DRAW of n is (s >>> 33) modulo n");
+        C.about("Term 5", "for each DRAW s becomes s * 6364136223846793005 + 1442695040888963407 (a long that "
+                + "wraps), and the DRAW of n is (s >>> 33) modulo n");
         BreedingHouse h = new BreedingHouse();
         int t = Check.tree(h, Trees.sum(8, "5"));
         int many = h.edits(t, 0);
         C.is("edits", many, 40);
-        for (long seed : new long[] {0, 1, -1, Long.MIN_VALUE, Long.MAX_VALUE, 1L << 31, -(1L << 33), 4611686018427387904L}) {
+        for (long seed : new long[] {0, 1, -1, Long.MIN_VALUE, Long.MAX_VALUE, 1L << 31, -(1L << 33),
+                4611686018427387904L}) {
             long s = seed * 6364136223846793005L + 1442695040888963407L;
             C.is("seed " + seed, h.birth(h.change(t, 0, seed), 6), (s >>> 33) % many);
         }
@@ -395,7 +432,8 @@ public final class TermsEdgesTest {
     }
 
     private static void howsThatAreDrawn() {
-        C.about("Term 7", "otherwise one CHOICE, a HOW, a DRAW of 5 (of 4 for others than TREES), a seed likewise, and change() with these");
+        C.about("Term 7", "otherwise one CHOICE, a HOW, a DRAW of 5 (of 4 for others than TREES), a seed likewise, "
+                + "and change() with these");
         for (int kind = 0; kind < 4; kind++) {
             BreedingHouse h = new BreedingHouse();
             h.populate(0, kind, 16, 4, kind);
@@ -447,7 +485,8 @@ public final class TermsEdgesTest {
     }
 
     private static void oneBirthAtSeveralPlaces() {
-        C.about("Term 7", "ISLANDS 0 .. 3 have 0 to 16 MEMBERS, BIRTHS, at PLACES 0, 1, .. (one BIRTH may be at several), and a STREAM.");
+        C.about("Term 7", "ISLANDS 0 .. 3 have 0 to 16 MEMBERS, BIRTHS, at PLACES 0, 1, .. (one BIRTH may be at "
+                + "several), and a STREAM.");
         BreedingHouse h = new BreedingHouse();
         h.populate(0, 0, 1, 1, 3);
         h.populate(3, 0, 16, 2, 3);
@@ -496,14 +535,18 @@ public final class TermsEdgesTest {
     }
 
     private static void orderOfTrees() {
-        C.about("Term 2", "by SIZE; then by the SORT of node 0, of CONSTANTS by them; then by the first part's SIZE, then by the second part's; then by the "
-                + "first part, the second, the third, in this ORDER");
-        String[] rising = {"(~ (~ (~ 0)))", "(~ (~ (# n)))", "(~ (+ 0 0))", "(# (~ (~ 0)))", "(+ 0 (~ 0))", "(+ 0 (# n))", "(+ 1 (~ 0))", "(+ n (# n))",
-            "(+ (~ 0) 0)", "(+ (~ 0) 1)", "(+ (# n) n)", "(- 0 (~ 0))", "(@ 0 (~ 0))", "(@ 0 (~ e))", "(@ (~ 0) 0)", "(@ (# n) e)"};
+        C.about("Term 2", "by SIZE; then by the SORT of node 0, of CONSTANTS by them; then by the first part's SIZE, "
+                + "then by the second part's; then by the first part, the second, the third, in this ORDER");
+        String[] rising = {"(~ (~ (~ 0)))", "(~ (~ (# n)))", "(~ (+ 0 0))", "(# (~ (~ 0)))", "(+ 0 (~ 0))",
+                "(+ 0 (# n))", "(+ 1 (~ 0))", "(+ n (# n))",
+            "(+ (~ 0) 0)", "(+ (~ 0) 1)", "(+ (# n) n)", "(- 0 (~ 0))", "(@ 0 (~ 0))", "(@ 0 (~ e))", "(@ (~ 0) 0)",
+            "(@ (# n) e)"};
         placesRise(rising);
-        String[] six = {"(? (< 0 0) 0 0)", "(? (< 0 0) 0 1)", "(? (< 0 0) n n)", "(? (< 0 1) 0 0)", "(? (< n n) n n)", "(? (= 0 0) 0 0)", "(? (= n n) n n)"};
+        String[] six = {"(? (< 0 0) 0 0)", "(? (< 0 0) 0 1)", "(? (< 0 0) n n)", "(? (< 0 1) 0 0)", "(? (< n n) n n)",
+                "(? (= 0 0) 0 0)", "(? (= n n) n n)"};
         placesRise(six);
-        String[] seven = {"(? (< 0 0) 0 (~ 0))", "(? (= n n) n (# n))", "(? (< 0 0) (~ 0) 0)", "(? (= n n) (# n) n)", "(? (! (< 0 0)) 0 0)", "(? (< 0 (~ 0)) 0 0)",
+        String[] seven = {"(? (< 0 0) 0 (~ 0))", "(? (= n n) n (# n))", "(? (< 0 0) (~ 0) 0)", "(? (= n n) (# n) n)",
+                "(? (! (< 0 0)) 0 0)", "(? (< 0 (~ 0)) 0 0)",
             "(? (< (~ 0) 0) 0 0)", "(? (= 0 (~ 0)) 0 0)", "(? (= (# n) n) n n)"};
         placesRise(seven);
         BreedingHouse h = new BreedingHouse();

@@ -77,6 +77,12 @@ public final class TextsEdgesTest {
         BreedingHouse g = new BreedingHouse();
         g.type('x' | '(' << 16);
         C.is("what stands behind a 0 doesn't come", Check.print(g, g.read(0)), "x");
+        BreedingHouse all = new BreedingHouse();
+        for (int v = 1; v < 256; v++) {
+            C.is("byte " + v, all.type(v), 1);
+            C.is("it comes", all.read(0), v >= '0' && v <= '9' || v >= 'x' && v <= 'z' || v == 'n' ? all.births() - 1
+                    : v == '(' || v == '-' ? -2 : -1);
+        }
         BreedingHouse order = new BreedingHouse();
         C.is("two bytes", order.type('7' << 8 | '1'), 2);
         C.is("one behind them", order.type(' '), 3);
@@ -203,7 +209,8 @@ public final class TextsEdgesTest {
     }
 
     private static void endsTooEarly() {
-        C.about("Term 4", "WRONG in a text is the first byte with which it can't go on so (the length, if it ends too early)");
+        C.about("Term 4", "WRONG in a text is the first byte with which it can't go on so (the length, if it ends "
+                + "too early)");
         String[] trees = {"", "-", "(", "(+", "(+ ", "(+ x", "(+ x ", "(+ x y", "(@ x (+ s e)"};
         for (String text : trees) {
             wrong(0, text, text.length());
@@ -239,6 +246,8 @@ public final class TextsEdgesTest {
         wrong(1, "x,y", 1);
         wrong(2, "1;0000", 1);
         wrong(2, "1:00 0", 4);
+        wrong(2, "1:000:q", 5);
+        wrong(2, "1:000/q", 5);
         wrong(2, "1:0000,1:0000", 6);
         wrong(2, "1:0000:", 6);
         wrong(3, "4;01", 1);
@@ -276,7 +285,8 @@ public final class TextsEdgesTest {
     }
 
     private static void wrongType() {
-        C.about("Term 4", "a node that isn't of the type that its place asks for (at its first byte, but at the sign behind a ( )");
+        C.about("Term 4", "a node that isn't of the type that its place asks for (at its first byte, but at the sign "
+                + "behind a ( )");
         for (String sign : new String[] {"<", "=", "&", "|", "!"}) {
             wrong(0, "(" + sign + " x y)", 1);
             wrong(0, "(+ (" + sign + " x y) 1)", 4);
@@ -412,6 +422,8 @@ public final class TextsEdgesTest {
         C.is("the sign", h.item(b, 2, 0), 8);
         C.is("a minus at the end", Check.code(h, "x y -"), 1);
         C.is("a minus in the middle", Check.code(h, "x y - ~"), 2);
+        Check.code(h, "x y z 5 6 7");
+        C.is("a minus at the end where a digit stood", Check.code(h, "x y -"), 3);
         wrong(1, "-x", 1);
         wrong(1, "x y -x", 5);
         wrong(1, "x y --1", 5);
@@ -471,6 +483,7 @@ public final class TextsEdgesTest {
         C.about("Term 3", "PRINTED likewise, without a 0 ahead.");
         BreedingHouse h = new BreedingHouse();
         C.is("distances", Check.print(h, Check.code(h, "x x b01 ~ j00")), "x x b1 ~ j0");
-        C.is("two digits", Check.print(h, Check.code(h, "x x b10" + Check.repeat(" ~", 10))), "x x b10" + Check.repeat(" ~", 10));
+        C.is("two digits", Check.print(h, Check.code(h, "x x b10" + Check.repeat(" ~", 10))), "x x b10"
+                + Check.repeat(" ~", 10));
     }
 }

@@ -9,6 +9,8 @@ public final class UnderstandingEdgesTest {
         searchUpToASize();
         searchWithoutFold();
         searchOfSeenCases();
+        searchOfEachSign();
+        searchInRows();
         searchWithoutCases();
         searchFinds();
         searchSizes();
@@ -35,6 +37,7 @@ public final class UnderstandingEdgesTest {
         codeWithoutTree();
         witnessAheadOfOne();
         witnessOfMachines();
+        witnessAnew();
         witnessOfNets();
         anotherWitness();
         minimalTrees();
@@ -43,6 +46,7 @@ public final class UnderstandingEdgesTest {
         robustCounts();
         robustWrong();
         codeOfTrees();
+        codeOfDeepTrees();
         codeTooLong();
         codeTooHigh();
         codeOfFolds();
@@ -68,7 +72,8 @@ public final class UnderstandingEdgesTest {
 
     private static void searchUpToASize() {
         C.about("Promise 48", "The least TREE in the ORDER, of a SIZE up to size");
-        int[][] numbers = {{7, 1, 7, 20, 2, 20}, {7, 1, -7, 20, 2, -20}, {7, 1, 14, 20, 2, 40}, {17, 3, 14, 20, 7, 13}, {17, 3, 37, 20, 7, 47}};
+        int[][] numbers = {{7, 1, 7, 20, 2, 20}, {7, 1, -7, 20, 2, -20}, {7, 1, 14, 20, 2, 40}, {17, 3, 14, 20, 7, 13},
+                {17, 3, 37, 20, 7, 47}};
         String[] least = {"x", "(~ x)", "(+ x x)", "(- x y)", "(+ x (+ x y))"};
         int[] sizes = {1, 2, 3, 3, 5};
         for (int k = 0; k < 5; k++) {
@@ -122,11 +127,70 @@ public final class UnderstandingEdgesTest {
         wrap.add(MOST, 1, 90, LEAST, 1, false);
         wrap.add(LEAST, 3, 90, LEAST + 3, 1, false);
         C.is("numbers wrap", found(wrap, 3), "(+ x y)");
-        BreedingHouse fault = new BreedingHouse();
-        fault.add(40, 0, 50, 0, 1, false);
-        fault.add(40, 8, 50, 5, 1, false);
-        fault.add(90, 9, 50, 10, 1, false);
-        C.is("a fault is no 0", found(fault, 3), "none");
+        BreedingHouse weights = new BreedingHouse();
+        weights.add(40, 50, 60, 1, 1, false);
+        weights.add(40, 50, 60, 2, 2, false);
+        C.is("a weight is no leaf", weights.search(1), -1);
+    }
+
+    private static void searchOfEachSign() {
+        C.about("Promise 48", "whose ERROR is 0 at all SEEN CASES");
+        String[] signs = {"+", "-", "*", "/", "%"};
+        int[][] due = {{47, 33, 50, 2080}, {33, 27, 50, 2016}, {280, 90, 0, 65536}, {5, 10, 0, 64}, {5, 0, 0, 0}};
+        int[][] numbers = {{40, 7}, {30, 3}, {50, 0}, {2048, 32}};
+        for (int s = 0; s < 5; s++) {
+            BreedingHouse h = new BreedingHouse();
+            for (int k = 0; k < 4; k++) {
+                if (s < 3 || k != 2) {
+                    h.add(numbers[k][0], numbers[k][1], -77, due[s][k], 1, false);
+                }
+            }
+            C.is("sign " + signs[s], found(h, 3), "(" + signs[s] + " x y)");
+            if (s >= 3) {
+                h.add(50, 0, -77, 0, 1, false);
+                C.is("a quotient by 0 is no 0", found(h, 3), "none");
+            }
+        }
+        BreedingHouse one = new BreedingHouse();
+        one.add(40, 0, 0, -40, 1, false);
+        one.add(MOST, 0, 0, -MOST, 1, false);
+        C.is("~", found(one, 2), "(~ x)");
+    }
+
+    private static void searchInRows() {
+        C.about("Promise 48", "whose ERROR is 0 at all SEEN CASES");
+        BreedingHouse h = new BreedingHouse();
+        Check.put(h, 7, 33);
+        h.add(0, 0, 0, 33, 1, false);
+        C.is("the last of the row", found(h, 2), "(# 1)");
+        h.put(7);
+        h.add(0, 0, 0, 0, 1, false);
+        C.is("behind the last is no 0", found(h, 2), "none");
+        BreedingHouse full = new BreedingHouse();
+        Check.put(full, 1, 2, 3, 4, 5, 6, 7, 88);
+        full.add(60, 60, 60, 88, 1, false);
+        C.is("the eighth", found(full, 2), "(# 7)");
+        full.drop(0);
+        Check.put(full, 1, 2, 3, 4, 5, 6, 7, 8);
+        full.add(60, 60, 60, 41, 1, false);
+        Check.put(full, 1, 2, 3, 4, 5, 6, 7, 8);
+        full.add(41, 61, 61, 57, 1, false);
+        full.add(57, 62, 62, 0, 1, true);
+        C.is("there is no ninth", found(full, 2), "none");
+        String[] within = {"(~ (# 0))", "(+ x (# 0))", "(+ (# 0) x)"};
+        int[][] wants = {{-33, 0}, {93, 60}, {93, 60}};
+        for (int k = 0; k < 3; k++) {
+            BreedingHouse one = new BreedingHouse();
+            one.put(33);
+            one.add(60, 70, 80, wants[k][0], 1, false);
+            C.is(within[k] + " is right there", one.hits(Check.tree(one, within[k]), false), 1);
+            one.add(60, 70, 80, wants[k][1], 1, false);
+            C.is("a fault within is no 0", found(one, 4), "none");
+        }
+        BreedingHouse below = new BreedingHouse();
+        Check.put(below, 7, 33);
+        below.add(-1, 0, 0, 2, 1, false);
+        C.is("nor one ahead of the first", found(below, 2).equals("(# x)"), false);
     }
 
     private static void searchWithoutCases() {
@@ -183,8 +247,10 @@ public final class UnderstandingEdgesTest {
 
     private static void safe() {
         C.about("Term 8", "SAFE is a TREE's node with no /, %, # or @ in it, itself among it.");
-        String[] unsafe = {"(/ x y)", "(% x y)", "(# x)", "(@ x y)", "(~ (/ x y))", "(+ y (% x y))", "(? (< (# x) 1) y z)", "(* (@ x s) y)"};
-        String[] safe = {"x", "5", "n", "(~ x)", "(+ x y)", "(- x y)", "(* x y)", "(? (& (< x y) (| (= x y) (! (< x z)))) y z)"};
+        String[] unsafe = {"(/ x y)", "(% x y)", "(# x)", "(@ x y)", "(~ (/ x y))", "(+ y (% x y))",
+                "(? (< (# x) 1) y z)", "(* (@ x s) y)"};
+        String[] safe = {"x", "5", "n", "(~ x)", "(+ x y)", "(- x y)", "(* x y)",
+                "(? (& (< x y) (| (= x y) (! (< x z)))) y z)"};
         for (String a : unsafe) {
             stays("(- " + a + " " + a + ")");
             stays("(* 0 " + a + ")");
@@ -202,7 +268,8 @@ public final class UnderstandingEdgesTest {
     }
 
     private static void rule0() {
-        C.about("Term 8", "0: ~, +, -, * of CONSTANTS, / and % of CONSTANTS by another one than 0, if what comes of it is a CONSTANT: that.");
+        C.about("Term 8", "0: ~, +, -, * of CONSTANTS, / and % of CONSTANTS by another one than 0, if what comes of "
+                + "it is a CONSTANT: that.");
         rule("(~ 99)", 0, "-99");
         rule("(~ -99)", 0, "99");
         rule("(~ 0)", 0, "0");
@@ -297,7 +364,8 @@ public final class UnderstandingEdgesTest {
     }
 
     private static void rule5() {
-        C.about("Term 8", "5: a - a with a SAFE: 0; ? of a = a, a SAFE: the second part; ? of a < a, a SAFE: the third.");
+        C.about("Term 8", "5: a - a with a SAFE: 0; ? of a = a, a SAFE: the second part; ? of a < a, a SAFE: the "
+                + "third.");
         rule("(- x x)", 5, "0");
         rule("(- (+ x 5) (+ x 5))", 5, "0");
         rule("(- 5 5)", 0, "0");
@@ -341,7 +409,8 @@ public final class UnderstandingEdgesTest {
     }
 
     private static void greatestNode() {
-        C.about("Term 8", "that is done at the node with the greatest number at which one does, the least such RULE; each time is a ROW.");
+        C.about("Term 8", "that is done at the node with the greatest number at which one does, the least such RULE; "
+                + "each time is a ROW.");
         BreedingHouse h = new BreedingHouse();
         h.simple(Check.tree(h, "(+ (+ x 0) (+ y 0))"));
         int[] due = {4, 1, 1, 1};
@@ -399,7 +468,7 @@ public final class UnderstandingEdgesTest {
         C.is("still", h.rows(), 0);
         h.simple(b);
         C.is("two", h.rows(), 2);
-        h.equal(b, b);
+        h.equal(Check.tree(h, "(+ 0 (~ (~ x)))"), Check.tree(h, "(* 1 (* 1 (* 1 x)))"));
         h.proves(b, b);
         h.minimal(b);
         C.is("others leave them", h.rows(), 2);
@@ -419,7 +488,8 @@ public final class UnderstandingEdgesTest {
     }
 
     private static void provesTrees() {
-        C.about("Promise 52", "not if one of them is no TREE (also without ROWS); of TREES without ROWS whether both are the same");
+        C.about("Promise 52", "not if one of them is no TREE (also without ROWS); of TREES without ROWS whether both "
+                + "are the same");
         BreedingHouse h = new BreedingHouse();
         int[] births = {Check.tree(h, "x"), Check.code(h, "x"), Check.machine(h, "1:0000"), Check.net(h, "2:")};
         int same = Check.tree(h, "x");
@@ -451,13 +521,16 @@ public final class UnderstandingEdgesTest {
         int b = Check.tree(h, "(- (+ y (~ 5)) 0)");
         h.simple(b);
         C.is("two rows", h.rows(), 2);
+        h.equal(x, Check.tree(h, "(+ x 0)"));
         C.is("themselves", h.proves(b, Check.tree(h, "(+ y -5)")), true);
         C.is("they lead elsewhere", h.proves(b, y), false);
         C.is("one row isn't all", h.proves(b, Check.tree(h, "(- (+ y -5) 0)")), false);
         C.is("a node that there isn't", h.proves(x, x), false);
         C.is("the first doesn't fit", h.proves(Check.tree(h, "(- (+ y -5) 0)"), Check.tree(h, "(+ y -5)")), false);
-        C.is("the second doesn't fit", h.proves(Check.tree(h, "(- (+ y (~ 5)) 1)"), Check.tree(h, "(- (+ y -5) 1)")), false);
-        C.is("a rule that isn't the least one there", h.proves(Check.tree(h, "(+ (* 0 (~ 7)) 0)"), Check.tree(h, "(* 0 -7)")), true);
+        C.is("the second doesn't fit", h.proves(Check.tree(h, "(- (+ y (~ 5)) 1)"), Check.tree(h, "(- (+ y -5) 1)")),
+                false);
+        C.is("a rule that isn't the least one there", h.proves(Check.tree(h, "(+ (* 0 (~ 7)) 0)"), Check.tree(h,
+                "(* 0 -7)")), true);
         C.is("of other trees", h.proves(Check.tree(h, "(* (- x (~ 9)) 1)"), Check.tree(h, "(- x -9)")), true);
     }
 
@@ -490,6 +563,14 @@ public final class UnderstandingEdgesTest {
         equalIs(3, "2:01", "2:01" + Check.repeat(",01", 39), 1);
         equalIs(3, "8:", "8:45,46,47,56,57,67,01,02,12", 1);
         equalIs(3, "8:", "8:34", 0);
+        for (int lines = 2; lines <= 8; lines++) {
+            int middle = (lines - 1) / 2;
+            for (int i = 0; i < lines; i++) {
+                for (int j = i + 1; j < lines; j++) {
+                    equalIs(3, lines + ":", lines + ":" + i + j, i == middle || j == middle ? 0 : 1);
+                }
+            }
+        }
         equalIs(3, SORTS8, SORTS8.replace(",34", ""), 0);
         BreedingHouse h = new BreedingHouse();
         h.set(0, 10);
@@ -516,6 +597,8 @@ public final class UnderstandingEdgesTest {
         equalIs(1, "x y +", "y x +", 2);
         BreedingHouse h = new BreedingHouse();
         C.is("code and tree", h.equal(Check.code(h, "x 1 *"), Check.tree(h, "x")), 1);
+        C.is("code and tree", h.equal(Check.code(h, "x y + z <"), Check.tree(h, "(? (< (+ x y) z) 1 0)")), 1);
+        C.is("rule 6 and none", h.equal(Check.tree(h, "(? (! (< x y)) 1 2)"), Check.tree(h, "(? (< x y) 2 1)")), 1);
         C.is("tree and code", h.equal(Check.tree(h, "x"), Check.code(h, "x 1 *")), 1);
         C.is("a machine and a tree", h.equal(Check.machine(h, "3:0000"), Check.tree(h, "3")), 2);
         C.is("a net and code", h.equal(Check.net(h, "2:"), Check.code(h, "9")), 0);
@@ -531,14 +614,12 @@ public final class UnderstandingEdgesTest {
         int q = Check.tree(h, b);
         C.is("equal of " + a + " and " + b, h.equal(p, q), due.length == 0 ? 2 : 0);
         C.is("and the other way round", h.equal(q, p), due.length == 0 ? 2 : 0);
-        for (int what = 0; what < 15; what++) {
-            C.is("witness " + what, h.witness(what), what < due.length ? due[what] : 0);
-        }
+        C.witnessIs(h, due);
     }
 
     private static void equalTries() {
-        C.about("Term 8", "then x, y, z each -2, -1, .. 2 (z the fastest, x the slowest) with the ROW without numbers, then all these with the ROW "
-                + "1, 2, 3");
+        C.about("Term 8", "then x, y, z each -2, -1, .. 2 (z the fastest, x the slowest) with the ROW without "
+                + "numbers, then all these with the ROW 1, 2, 3");
         shown("x", "0", -2, -2, -2);
         shown("(? (= x 2) 1 0)", "0", 2, -2, -2);
         shown("(? (= x 3) 1 0)", "0");
@@ -571,10 +652,7 @@ public final class UnderstandingEdgesTest {
         h.add(MOST, LEAST, 7, 0, 1, true);
         h.add(4, 5, 6, 0, 1, false);
         C.is("shown by a hidden case", h.equal(p, q), 0);
-        int[] due = {MOST, LEAST, 7, 8, 1, 2, 3, 4, 5, 6, 7, 8, 0, 0, 0};
-        for (int what = 0; what < 15; what++) {
-            C.is("witness " + what, h.witness(what), due[what]);
-        }
+        C.witnessIs(h, MOST, LEAST, 7, 8, 1, 2, 3, 4, 5, 6, 7, 8);
         h.drop(1);
         h.equal(p, q);
         C.is("the last case", h.witness(0), 4);
@@ -586,7 +664,8 @@ public final class UnderstandingEdgesTest {
     }
 
     private static void equalByLimit() {
-        C.about("Term 8", "0 with the first on which the OUTCOMES are not alike and neither is FAULT 3; 2 if there is none such");
+        C.about("Term 8", "0 with the first on which the OUTCOMES are not alike and neither is FAULT 3; 2 if there "
+                + "is none such");
         BreedingHouse h = new BreedingHouse();
         int longer = Check.tree(h, "(+ 0 " + Trees.sum(5, "y") + ")");
         int x = Check.tree(h, "x");
@@ -634,38 +713,59 @@ public final class UnderstandingEdgesTest {
         C.is("0 doesn't", h.witness(0), -2);
         C.about("Promise 54", "0 ahead of one");
         BreedingHouse g = new BreedingHouse();
-        for (int what = 0; what < 15; what++) {
-            C.is("witness " + what, g.witness(what), 0);
-        }
-    }
-
-    private static void witnessIs(BreedingHouse h, int... due) {
-        for (int what = 0; what < 15; what++) {
-            C.is("witness " + what, h.witness(what), what < due.length ? due[what] : 0);
-        }
+        C.witnessIs(g);
     }
 
     private static void witnessOfMachines() {
-        C.about("Promise 54", "Of two MACHINES x, y, z are 0 and the ROW is the shortest, of these the least by its first number, the second, .., of "
-                + "numbers 0 .. 3");
+        C.about("Promise 54", "Of two MACHINES x, y, z are 0 and the ROW is the shortest, of these the least by its "
+                + "first number, the second, .., of numbers 0 .. 3");
         BreedingHouse h = new BreedingHouse();
         h.equal(Check.tree(h, "x"), Check.tree(h, "1"));
         int one = Check.machine(h, "1:0000");
         h.equal(one, Check.machine(h, "2:0000"));
-        witnessIs(h);
+        C.witnessIs(h);
         for (int c = 0; c < 4; c++) {
             String edges = "0000".substring(0, c) + "1" + "0000".substring(c + 1);
             h.equal(Check.machine(h, "1:" + edges + ";2:0000"), one);
-            witnessIs(h, 0, 0, 0, 1, c);
+            C.witnessIs(h, 0, 0, 0, 1, c);
         }
         h.equal(Check.machine(h, "1:0011;2:0000"), one);
-        witnessIs(h, 0, 0, 0, 1, 2);
+        C.witnessIs(h, 0, 0, 0, 1, 2);
         h.equal(Check.machine(h, "1:1200;1:0003;1:3000;2:0000"), one);
-        witnessIs(h, 0, 0, 0, 2, 0, 3);
-        h.equal(Check.machine(h, "0:0001;0:0002;0:0003;0:0004;0:0005;1:0000"), Check.machine(h, "0:0001;0:0002;0:0003;0:0004;0:0005;0:0000"));
-        witnessIs(h, 0, 0, 0, 5, 3, 3, 3, 3, 3);
-        h.equal(Check.machine(h, "0:0001;0:1112;0:2223;0:3334;0:4445;1:5550"), Check.machine(h, "0:0001;0:1112;0:2223;0:3334;0:4445;1:5551"));
-        witnessIs(h, 0, 0, 0, 10, 3, 3, 3, 3, 3, 3, 3, 3, 3, 3);
+        C.witnessIs(h, 0, 0, 0, 2, 0, 3);
+        h.equal(Check.machine(h, "0:0001;0:0002;0:0003;0:0004;0:0005;1:0000"), Check.machine(h,
+                "0:0001;0:0002;0:0003;0:0004;0:0005;0:0000"));
+        C.witnessIs(h, 0, 0, 0, 5, 3, 3, 3, 3, 3);
+        h.equal(Check.machine(h, "0:0001;0:1112;0:2223;0:3334;0:4445;1:5550"), Check.machine(h,
+                "0:0001;0:1112;0:2223;0:3334;0:4445;1:5551"));
+        C.witnessIs(h, 0, 0, 0, 10, 3, 3, 3, 3, 3, 3, 3, 3, 3, 3);
+        h.equal(one, Check.machine(h, "1:1111;1:2222;2:0000"));
+        C.witnessIs(h, 0, 0, 0, 2, 0, 0);
+        h.equal(Check.machine(h, "1:1111;1:2222;2:0000"), one);
+        C.witnessIs(h, 0, 0, 0, 2, 0, 0);
+        // 25 pairs of states can be come to, 15 of them by up to four numbers.
+        int p = Check.machine(h, "0:1000;0:2111;0:3222;0:4333;0:0454;1:5555");
+        int q = Check.machine(h, "0:0100;0:1211;0:2322;0:3433;0:4054;1:5555");
+        C.is("not equal", h.equal(p, q), 0);
+        C.witnessIs(h, 0, 0, 0, 5, 0, 0, 0, 0, 2);
+        C.is("not equal", h.equal(q, p), 0);
+        C.witnessIs(h, 0, 0, 0, 5, 0, 0, 0, 0, 2);
+    }
+
+    private static void witnessAnew() {
+        C.about("Promise 54", "3 how many its ROW has, 4 .. 14 these (0 behind the last)");
+        String six = "0:0001;0:1112;0:2223;0:3334;0:4445;1:5550";
+        String five = "0:0001;0:1112;0:2223;0:3334;0:4445;1:5551";
+        BreedingHouse h = new BreedingHouse();
+        h.equal(Check.machine(h, six), Check.machine(h, five));
+        h.equal(Check.tree(h, "n"), Check.tree(h, "0"));
+        C.witnessIs(h, -2, -2, -2, 3, 1, 2, 3);
+        h.equal(Check.machine(h, six), Check.machine(h, five));
+        h.equal(Check.net(h, "2:"), Check.net(h, "2:01"));
+        C.witnessIs(h, 0, 0, 0, 2, 1, 0);
+        h.equal(Check.machine(h, six), Check.machine(h, five));
+        h.equal(Check.machine(h, "1:0000"), Check.machine(h, "2:0000"));
+        C.witnessIs(h);
     }
 
     private static void witnessOfNets() {
@@ -674,15 +774,15 @@ public final class UnderstandingEdgesTest {
         h.add(5, 6, 7, 0, 1, false);
         h.equal(Check.tree(h, "x"), Check.tree(h, "1"));
         h.equal(Check.net(h, "2:"), Check.net(h, "2:01"));
-        witnessIs(h, 0, 0, 0, 2, 1, 0);
+        C.witnessIs(h, 0, 0, 0, 2, 1, 0);
         h.equal(Check.net(h, "8:"), Check.net(h, "8:37"));
-        witnessIs(h, 0, 0, 0, 8, 0, 0, 0, 1);
+        C.witnessIs(h, 0, 0, 0, 8, 0, 0, 0, 1);
         h.equal(Check.net(h, "8:"), Check.net(h, "8:03"));
-        witnessIs(h, 0, 0, 0, 8, 1);
+        C.witnessIs(h, 0, 0, 0, 8, 1);
         h.equal(Check.net(h, "3:01,12"), Check.net(h, "3:01,12,01"));
-        witnessIs(h, 0, 0, 0, 3, 1, 1);
+        C.witnessIs(h, 0, 0, 0, 3, 1, 1);
         h.equal(Check.net(h, "4:01,12,23,12"), Check.net(h, "4:01,12,23,01,12"));
-        witnessIs(h, 0, 0, 0, 4, 1, 1, 0, 1);
+        C.witnessIs(h, 0, 0, 0, 4, 1, 1, 0, 1);
     }
 
     private static void anotherWitness() {
@@ -699,10 +799,14 @@ public final class UnderstandingEdgesTest {
     }
 
     private static void minimalTrees() {
-        C.about("Promise 55", "As long as one of its EDITS of HOW 3 (TREES, MACHINES), 2 (CODE), 1 (NETS) has no greater SCORE over SEEN CASES, the "
-                + "first such is done: what comes of it.");
+        C.about("Promise 55", "As long as one of its EDITS of HOW 3 (TREES, MACHINES), 2 (CODE), 1 (NETS) has no "
+                + "greater SCORE over SEEN CASES, the first such is done: what comes of it.");
         BreedingHouse h = new BreedingHouse();
         C.is("a leaf", minimal(h, 0, "y"), "y");
+        int sum = Check.tree(h, "(+ z n)");
+        int other = Check.tree(h, "(* 1 2)");
+        C.is("of the one that is told", Check.print(h, h.minimal(sum)), "z");
+        C.is("of the one that is told", Check.print(h, h.minimal(other)), "1");
         C.is("without cases the first part", minimal(h, 0, "(+ y x)"), "y");
         C.is("60 nodes", minimal(h, 0, Trees.ofSize(60)), "x");
         C.is("12 deep", minimal(h, 0, Trees.chain(12)), "x");
@@ -733,13 +837,16 @@ public final class UnderstandingEdgesTest {
         C.about("Promise 55", "has no greater SCORE over SEEN CASES");
         BreedingHouse h = new BreedingHouse();
         h.add(4, 1, 0, 5, 1, false);
+        h.add(4, 1, 0, 99, 9, true);
         C.is("greater ones aren't done", minimal(h, 0, "(+ x y)"), "(+ x y)");
         C.is("the same is", minimal(h, 0, "(+ x (+ y (- y y)))"), "(+ x y)");
         C.is("lesser is", minimal(h, 0, "(+ (+ x y) 1)"), "(+ x y)");
-        C.is("against what it is by then", minimal(h, 0, "(- (+ x (+ y y)) y)"), minimalByHand(h, "(- (+ x (+ y y)) y)"));
+        C.is("against what it is by then", minimal(h, 0, "(- (+ x (+ y y)) y)"), minimalByHand(h,
+                "(- (+ x (+ y y)) y)"));
         C.is("code", minimal(h, 1, "x y + ~ ~ ~ ~"), "x y +");
         h.set(0, 10);
-        C.is("what has too many steps", minimal(h, 0, "(+ (+ x y) " + Trees.sum(4, "0") + ")"), minimalByHand(h, "(+ (+ x y) " + Trees.sum(4, "0") + ")"));
+        C.is("what has too many steps", minimal(h, 0, "(+ (+ x y) " + Trees.sum(4, "0") + ")"), minimalByHand(h,
+                "(+ (+ x y) " + Trees.sum(4, "0") + ")"));
     }
 
     /** The same, step by step, with edit() and score(). */
@@ -761,7 +868,8 @@ public final class UnderstandingEdgesTest {
     }
 
     private static void robustCounts() {
-        C.about("Promise 56", "Of its EDITS of a HOW: how many have a lesser (what 0), the same (1), a greater SCORE over SEEN CASES (2).");
+        C.about("Promise 56", "Of its EDITS of a HOW: how many have a lesser (what 0), the same (1), a greater SCORE "
+                + "over SEEN CASES (2).");
         BreedingHouse h = new BreedingHouse();
         int five = Check.tree(h, "5");
         int x = Check.tree(h, "x");
@@ -809,8 +917,9 @@ public final class UnderstandingEdgesTest {
     }
 
     private static void codeOfTrees() {
-        C.about("Promise 57", "leaves as they are; of one or two parts: these, then its sign; ! of t: t, PUSH 0, = ; & of t, u: t, b to the last, u, "
-                + "j 1, PUSH 0; | of t, u: t, b 2, PUSH 1, j over u, u; ? of t, u, v: t, b to v, u, j over v, v");
+        C.about("Promise 57", "leaves as they are; of one or two parts: these, then its sign; ! of t: t, PUSH 0, = ; "
+                + "& of t, u: t, b to the last, u, j 1, PUSH 0; | of t, u: t, b 2, PUSH 1, j over u, u; ? of t, u, "
+                + "v: t, b to v, u, j over v, v");
         C.is("leaves", compiled(0, "-99"), "-99");
         C.is("leaves", compiled(0, "n"), "n");
         String[] signs = {"+", "-", "*", "/", "%"};
@@ -826,6 +935,29 @@ public final class UnderstandingEdgesTest {
         C.is("|", compiled(0, "(? (| (= x y) (< y z)) 1 2)"), "x y = b2 1 j3 y z < b2 1 j1 2");
     }
 
+    private static void codeOfDeepTrees() {
+        C.about("Promise 57", "if that has at most 60 instructions and is SOUND");
+        C.is("12 deep", compiled(0, Trees.chain(12)), "x" + Check.repeat(" ~", 11));
+        C.is("12 deep in first parts", compiled(0, Check.repeat("(+ ", 11) + "x" + Check.repeat(" 2)", 11)), "x"
+                + Check.repeat(" 2 +", 11));
+        C.is("12 deep in second parts", compiled(0, "(+ 1 (+ 2 (+ 3 (+ 4 (+ 5 (+ 6 (~ (~ (~ (~ (~ x)))))))))))"),
+                "1 2 3 4 5 6 x ~ ~ ~ ~ ~ + + + + + +");
+        C.is("12 deep in third parts", compiled(0, Check.repeat("(? (= 1 2) 3 ", 9) + "(~ (~ x))" + Check.repeat(")",
+                9)),
+                "1 2 = b2 3 j51 1 2 = b2 3 j45 1 2 = b2 3 j39 1 2 = b2 3 j33 1 2 = b2 3 j27 1 2 = b2 3 j21 1 2 = b2 3 "
+                + "j15 "
+                + "1 2 = b2 3 j9 1 2 = b2 3 j3 x ~ ~");
+        C.is("12 deep in &", compiled(0, "(? " + Check.repeat("(& (= 1 1) ", 8) + "(= (~ 1) 1)" + Check.repeat(")", 8)
+                + " x 3)"),
+                "1 1 = b47 1 1 = b41 1 1 = b35 1 1 = b29 1 1 = b23 1 1 = b17 1 1 = b11 1 1 = b5 1 ~ 1 ="
+                + Check.repeat(" j1 0", 8) + " b2 x j1 3");
+        C.is("12 deep in |", compiled(0, "(? " + Check.repeat("(| (= 1 1) ", 8) + "(= (~ 1) 1)" + Check.repeat(")", 8)
+                + " x 3)"),
+                "1 1 = b2 1 j46 1 1 = b2 1 j40 1 1 = b2 1 j34 1 1 = b2 1 j28 1 1 = b2 1 j22 1 1 = b2 1 j16 1 1 = b2 1 "
+                + "j10 "
+                + "1 1 = b2 1 j4 1 ~ 1 = b2 x j1 3");
+    }
+
     private static void codeTooLong() {
         C.about("Promise 57", "if that has at most 60 instructions and is SOUND");
         C.is("60 of 60 nodes", compiled(0, Trees.ofSize(60)).split(" ").length, 60);
@@ -836,7 +968,8 @@ public final class UnderstandingEdgesTest {
         C.is("60 nodes", Trees.nodes(longer), 60);
         C.is("61 instructions", compiled(0, longer), "none");
         C.is("61 by j 1, PUSH 0", compiled(0, "(? (& (< x y) (< x y)) 1 " + Trees.ofSize(49) + ")"), "none");
-        C.is("60 by j 1, PUSH 0", compiled(0, "(? (& (< x y) (< x y)) 1 " + Trees.ofSize(48) + ")").split(" ").length, 60);
+        C.is("60 by j 1, PUSH 0", compiled(0, "(? (& (< x y) (< x y)) 1 " + Trees.ofSize(48) + ")").split(" ").length,
+                60);
         C.is("61 by !", compiled(0, "(? (! (< x y)) 1 " + Trees.ofSize(53) + ")"), "none");
         C.is("60 by !", compiled(0, "(? (! (< x y)) 1 " + Trees.ofSize(52) + ")").split(" ").length, 60);
     }
@@ -849,7 +982,8 @@ public final class UnderstandingEdgesTest {
         }
         C.is("a pile of 8", compiled(0, right), Check.repeat("y ", 7) + "x" + Check.repeat(" +", 7));
         C.is("a pile of 9", compiled(0, "(+ y " + right + ")"), "none");
-        C.is("a pile of 8, the other way round", compiled(0, "(+ " + right + " y)"), Check.repeat("y ", 7) + "x" + Check.repeat(" +", 7) + " y +");
+        C.is("a pile of 8, the other way round", compiled(0, "(+ " + right + " y)"), Check.repeat("y ", 7) + "x"
+                + Check.repeat(" +", 7) + " y +");
     }
 
     private static void codeOfFolds() {
@@ -881,7 +1015,8 @@ public final class UnderstandingEdgesTest {
     }
 
     private static void treeOfTruths() {
-        C.about("Term 8", "(a < or = that another instruction than o, d, w takes, or that is left at the end, is ? of it, 1, 0)");
+        C.about("Term 8", "(a < or = that another instruction than o, d, w takes, or that is left at the end, is ? "
+                + "of it, 1, 0)");
         C.is("left at the end", compiled(1, "x y <"), "(? (< x y) 1 0)");
         C.is("left at the end", compiled(1, "x y ="), "(? (= x y) 1 0)");
         C.is("taken by ~", compiled(1, "x y < ~"), "(~ (? (< x y) 1 0))");
@@ -904,6 +1039,12 @@ public final class UnderstandingEdgesTest {
             C.is("w has " + a + " twice", compiled(1, a + " " + a + " w -"), "none");
             C.is("d may have it", compiled(1, a + " d -").equals("none"), false);
         }
+        C.is("w", compiled(1, "x y w -"), "(- y x)");
+        C.is("w of an upper one that isn't", compiled(1, "z x y / w -"), "(- (/ x y) z)");
+        C.is("w of a lower one that isn't", compiled(1, "x y / z w -"), "(- z (/ x y))");
+        C.is("w of two that aren't, one within", compiled(1, "x y z / + x # w -"), "none");
+        C.is("w of two that aren't, one within", compiled(1, "x # x y z / + w -"), "none");
+        C.is("o of one that isn't, within", compiled(1, "n x y z / + o"), "none");
     }
 
     /** Code whose tree has 55 nodes, 7 deep. */
@@ -958,23 +1099,26 @@ public final class UnderstandingEdgesTest {
         }
     }
 
-    private static void least(String text, String due) {
-        BreedingHouse h = new BreedingHouse();
-        int b = Check.machine(h, text);
-        int c = h.least(b);
-        C.is("least of " + text, Check.print(h, c), due);
-        C.is("equal", h.equal(b, c), 1);
-    }
-
     private static void leastStates() {
         C.about("Promise 58", "A MACHINE with the least states that is EQUAL to one");
-        least("5:0000", "5:0000");
-        least("5:1111;5:1111", "5:0000");
-        least("5:0000;6:1111", "5:0000");
-        least("5:1111;5:2222;5:3333;5:4444;5:5555;5:0000", "5:0000");
-        least("0:1111;0:2222;0:3333;0:4444;0:5555;1:0000", "0:1111;0:2222;0:3333;0:4444;0:5555;1:0000");
-        least("0:1111;0:2222;0:3333;0:4444;0:5555;0:0001", "0:0000");
-        least("0:1111;1:2222;0:3333;1:4444;0:5555;1:0000", "0:1111;1:0000");
+        C.leastIs("5:0000", "5:0000");
+        C.leastIs("5:1111;5:1111", "5:0000");
+        C.leastIs("5:0000;6:1111", "5:0000");
+        C.leastIs("5:1111;5:2222;5:3333;5:4444;5:5555;5:0000", "5:0000");
+        C.leastIs("0:1111;0:2222;0:3333;0:4444;0:5555;1:0000", "0:1111;0:2222;0:3333;0:4444;0:5555;1:0000");
+        C.leastIs("0:1111;0:2222;0:3333;0:4444;0:5555;0:0001", "0:0000");
+        C.leastIs("0:1111;1:2222;0:3333;1:4444;0:5555;1:0000", "0:1111;1:0000");
+        for (int c = 0; c < 4; c++) {
+            // States 1 and 2 are told apart by one class alone.
+            char[] start = "0000".toCharArray();
+            start[(c + 1) % 4] = '1';
+            start[(c + 2) % 4] = '2';
+            char[] first = "0000".toCharArray();
+            first[c] = '3';
+            BreedingHouse apart = new BreedingHouse();
+            int m = Check.machine(apart, "0:" + new String(start) + ";5:" + new String(first) + ";5:0000;9:0000");
+            C.is("class " + c + " tells them apart", apart.birth(apart.least(m), 1), 4);
+        }
         C.about("Promise 58", "IllegalArgumentException: it is no MACHINE.");
         BreedingHouse h = new BreedingHouse();
         int[] others = {Check.tree(h, "x"), Check.code(h, "x"), Check.net(h, "2:")};
@@ -991,11 +1135,12 @@ public final class UnderstandingEdgesTest {
     }
 
     private static void leastInOrder() {
-        C.about("Promise 58", "its states in the order in which they are come to first (by CLASSES 0 to 3 from state 0, then from state 1, ..)");
-        least("0:5432;1:1111;2:2222;3:3333;4:4444;5:5555", "0:1234;5:1111;4:2222;3:3333;2:4444");
-        least("0:0002;1:1111;2:0001", "0:0001;2:0002;1:2222");
-        least("0:2111;7:1111;9:1111", "0:1222;9:2222;7:2222");
-        least("0:0300;1:1111;1:2222;2:4000;3:0120", "0:0100;2:2000;3:0330;1:3333");
+        C.about("Promise 58", "its states in the order in which they are come to first (by CLASSES 0 to 3 from state "
+                + "0, then from state 1, ..)");
+        C.leastIs("0:5432;1:1111;2:2222;3:3333;4:4444;5:5555", "0:1234;5:1111;4:2222;3:3333;2:4444");
+        C.leastIs("0:0002;1:1111;2:0001", "0:0001;2:0002;1:2222");
+        C.leastIs("0:2111;7:1111;9:1111", "0:1222;9:2222;7:2222");
+        C.leastIs("0:0300;1:1111;1:2222;2:4000;3:0120", "0:0100;2:2000;3:0330;1:3333");
     }
 
     private static int sorted(BreedingHouse h, int net, int row, int upTo) {
@@ -1012,8 +1157,10 @@ public final class UnderstandingEdgesTest {
 
     private static void cleaned() {
         C.about("Promise 59", "A NET without those COMPARATORS that exchange nothing for any ZERO-ONE ROW.");
-        String[][] nets = {{"2:", "2:"}, {"2:01", "2:01"}, {"2:01,01", "2:01"}, {"2:01" + Check.repeat(",01", 39), "2:01"},
-            {"8:01" + Check.repeat(",67", 39), "8:01,67"}, {SORTS8, SORTS8}, {SORTS8 + ",07,34,67", SORTS8}, {"3:01,12,01,12,02", "3:01,12,01"}};
+        String[][] nets = {{"2:", "2:"}, {"2:01", "2:01"}, {"2:01,01", "2:01"}, {"2:01" + Check.repeat(",01", 39),
+                "2:01"},
+            {"8:01" + Check.repeat(",67", 39), "8:01,67"}, {SORTS8, SORTS8}, {SORTS8 + ",07,34,67", SORTS8},
+            {"3:01,12,01,12,02", "3:01,12,01"}};
         BreedingHouse h = new BreedingHouse();
         for (String[] one : nets) {
             C.is("clean of " + one[0], Check.print(h, h.clean(Check.net(h, one[0]))), one[1]);
@@ -1037,7 +1184,8 @@ public final class UnderstandingEdgesTest {
     }
 
     private static void unsorted() {
-        C.about("Promise 60", "The least number whose ZERO-ONE ROW a NET doesn't bring into order (0s ahead of 1s); -1 if there is none.");
+        C.about("Promise 60", "The least number whose ZERO-ONE ROW a NET doesn't bring into order (0s ahead of 1s); "
+                + "-1 if there is none.");
         BreedingHouse h = new BreedingHouse();
         for (int lines = 2; lines <= 8; lines++) {
             C.is("without comparators", h.unsorted(Check.net(h, lines + ":")), 1);
@@ -1069,9 +1217,11 @@ public final class UnderstandingEdgesTest {
     }
 
     private static void layers() {
-        C.about("Promise 61", "each COMPARATOR is in the layer behind the last one that has one of its lines; 0 without any");
+        C.about("Promise 61", "each COMPARATOR is in the layer behind the last one that has one of its lines; 0 "
+                + "without any");
         BreedingHouse h = new BreedingHouse();
-        String[] nets = {"2:", "8:", "2:01", "4:01,23", "4:01,12", "4:01,12,23", "4:12,01,23", "3:01,12,01", "8:01,23,45,67,07",
+        String[] nets = {"2:", "8:", "2:01", "4:01,23", "4:01,12", "4:01,12,23", "4:12,01,23", "3:01,12,01",
+                "8:01,23,45,67,07",
             "2:01" + Check.repeat(",01", 39), SORTS8, "4:01,01,23,12"};
         int[] due = {0, 0, 1, 1, 2, 3, 2, 3, 2, 40, 6, 3};
         for (int k = 0; k < nets.length; k++) {

@@ -234,12 +234,6 @@ public final class UnderstandingTest {
         C.fails("no birth", Check.INDEX, () -> h.proves(-1, 0));
     }
 
-    private static void witnessIs(BreedingHouse h, int... due) {
-        for (int what = 0; what < 15; what++) {
-            C.is("witness(" + what + ")", h.witness(what), what < due.length ? due[what] : 0);
-        }
-    }
-
     private static void equalTrees() {
         BreedingHouse h = new BreedingHouse();
         int x = Check.tree(h, "x");
@@ -247,22 +241,22 @@ public final class UnderstandingTest {
         C.is("itself", h.equal(x, x), 1);
         C.is("made simple", h.equal(y, Check.tree(h, "(* 1 y)")), 1);
         C.is("x and y", h.equal(x, y), 0);
-        witnessIs(h, -2, -1, -2);
+        C.witnessIs(h, -2, -1, -2);
         C.is("no proof", h.equal(Check.tree(h, "(+ x y)"), Check.tree(h, "(+ y x)")), 2);
-        witnessIs(h, -2, -1, -2);
+        C.witnessIs(h, -2, -1, -2);
         C.is("n", h.equal(Check.tree(h, "n"), Check.tree(h, "0")), 0);
-        witnessIs(h, -2, -2, -2, 3, 1, 2, 3);
+        C.witnessIs(h, -2, -2, -2, 3, 1, 2, 3);
         C.is("a fault", h.equal(Check.tree(h, "(/ 1 z)"), Check.tree(h, "(? (= z 0) 0 (/ 1 z))")), 0);
-        witnessIs(h, -2, -2, 0);
+        C.witnessIs(h, -2, -2, 0);
         C.is("two faults", h.equal(Check.tree(h, "(# (/ 1 0))"), Check.tree(h, "(# 9)")), 0);
         C.is("one fault", h.equal(Check.tree(h, "(/ 1 0)"), Check.tree(h, "(% 1 0)")), 2);
         Check.put(h, 4, 5);
         h.add(1, 1, 9, 0, 1, true);
         h.add(7, 8, 9, 0, 1, false);
         C.is("cases first", h.equal(x, y), 0);
-        witnessIs(h, 7, 8, 9);
+        C.witnessIs(h, 7, 8, 9);
         C.is("all cases", h.equal(Check.tree(h, "n"), Check.tree(h, "0")), 0);
-        witnessIs(h, 1, 1, 9, 2, 4, 5);
+        C.witnessIs(h, 1, 1, 9, 2, 4, 5);
         C.is("code and tree", h.equal(Check.code(h, "y 1 *"), y), 1);
         int jumps = Check.code(h, "x j0");
         C.is("code without a tree", h.equal(jumps, jumps), 2);
@@ -270,7 +264,7 @@ public final class UnderstandingTest {
         C.is("a machine and a tree", h.equal(Check.machine(h, "3:0000"), Check.tree(h, "3")), 2);
         C.is("a machine and a tree", h.equal(Check.machine(h, "3:0000"), Check.tree(h, "4")), 0);
         C.is("nets of other lines", h.equal(Check.net(h, "2:"), Check.net(h, "3:")), 0);
-        witnessIs(h, 1, 1, 9, 2, 4, 5);
+        C.witnessIs(h, 1, 1, 9, 2, 4, 5);
         C.fails("what 15", Check.ARGUMENT, () -> h.witness(15));
         C.fails("what -1", Check.ARGUMENT, () -> h.witness(-1));
         C.fails("no birth", Check.INDEX, () -> h.equal(0, 99));
@@ -294,17 +288,17 @@ public final class UnderstandingTest {
         C.is("itself", h.equal(a, a), 1);
         int one = Check.machine(h, "4:0000");
         C.is("at once", h.equal(a, one), 0);
-        witnessIs(h);
+        C.witnessIs(h);
         C.is("a longer one", h.equal(one, Check.machine(h, "4:1111;4:2222;4:0003;5:0000")), 0);
-        witnessIs(h, 0, 0, 0, 3, 0, 0, 3);
+        C.witnessIs(h, 0, 0, 0, 3, 0, 0, 3);
         C.is("not reached", h.equal(one, Check.machine(h, "4:0000;5:1111")), 1);
         C.is("the least", h.equal(Check.machine(h, "4:1212;4:0030;4:0300;5:0000"), one), 0);
-        witnessIs(h, 0, 0, 0, 2, 0, 2);
+        C.witnessIs(h, 0, 0, 0, 2, 0, 2);
         h.set(0, 10);
         int long1 = Check.machine(h, "1:1000;1:2000;1:3000;1:4000;1:5000;2:5555");
         int long2 = Check.machine(h, "1:0100;1:0200;1:0300;1:0400;1:0500;2:5555");
         C.is("both ways", h.equal(long1, long2), 0);
-        witnessIs(h, 0, 0, 0, 5);
+        C.witnessIs(h, 0, 0, 0, 5);
         int ring = Check.machine(h, "1:1111;1:2222;1:3333;1:4444;1:5555;1:0000");
         C.is("a ring", h.equal(ring, Check.machine(h, "1:0000")), 1);
         int six = Check.machine(h, "1:1111;0:2222;0:3333;0:4444;0:5555;0:0000");
@@ -318,14 +312,14 @@ public final class UnderstandingTest {
         int a = Check.net(h, "4:01,23,02,13,12");
         int b = Check.net(h, "4:01,12,23,01");
         C.is("unlike", h.equal(a, b), 0);
-        witnessIs(h, 0, 0, 0, 4, 1, 1, 0, 0);
+        C.witnessIs(h, 0, 0, 0, 4, 1, 1, 0, 0);
         C.is("the middle line alone counts", h.equal(Check.net(h, "3:01,12"), Check.net(h, "3:01,12,01")), 0);
         C.is("upper lines don't", h.equal(Check.net(h, "4:01,23"), Check.net(h, "4:01")), 1);
         h.set(0, 10);
         int longer = Check.net(h, "2:01,01,01,01,01,01,01,01,01,01,01,01");
         C.is("no limit", h.equal(longer, Check.net(h, "2:01")), 1);
         C.is("the least number", h.equal(Check.net(h, "2:"), Check.net(h, "2:01")), 0);
-        witnessIs(h, 0, 0, 0, 2, 1, 0);
+        C.witnessIs(h, 0, 0, 0, 2, 1, 0);
     }
 
     private static void minimals() {
@@ -471,22 +465,14 @@ public final class UnderstandingTest {
         return half + " " + half;
     }
 
-    private static void least(String text, String due) {
-        BreedingHouse h = new BreedingHouse();
-        int b = Check.machine(h, text);
-        int c = h.least(b);
-        C.is("least of " + text, Check.print(h, c), due);
-        C.is("equal", h.equal(b, c), 1);
-    }
-
     private static void leastMachines() {
-        least("7:0000", "7:0000");
-        least("7:1111;7:0000", "7:0000");
-        least("7:0000;8:1111", "7:0000");
-        least("1:2100;2:1111;3:2222", "1:1200;3:1111;2:2222");
-        least("1:3214;2:1111;2:2222;2:3333;9:0000", "1:1112;2:1111;9:0000");
-        least("0:0111;5:1022;0:0222", "0:0111;5:1022;0:0222");
-        least("1:1234;0:5555;0:5555;0:1111;3:4444;0:2222", "1:1112;0:1111;3:2222");
+        C.leastIs("7:0000", "7:0000");
+        C.leastIs("7:1111;7:0000", "7:0000");
+        C.leastIs("7:0000;8:1111", "7:0000");
+        C.leastIs("1:2100;2:1111;3:2222", "1:1200;3:1111;2:2222");
+        C.leastIs("1:3214;2:1111;2:2222;2:3333;9:0000", "1:1112;2:1111;9:0000");
+        C.leastIs("0:0111;5:1022;0:0222", "0:0111;5:1022;0:0222");
+        C.leastIs("1:1234;0:5555;0:5555;0:1111;3:4444;0:2222", "1:1112;0:1111;3:2222");
         BreedingHouse h = new BreedingHouse();
         C.fails("no machine", Check.ARGUMENT, () -> h.least(Check.tree(h, "x")));
         C.fails("no birth", Check.INDEX, () -> h.least(-1));
