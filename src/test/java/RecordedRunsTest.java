@@ -3,10 +3,9 @@ import java.lang.reflect.Method;
 import java.nio.file.Files;
 import java.nio.file.Path;
 import java.util.HashMap;
-import java.util.List;
 import java.util.Map;
 
-/** Long mixed runs with the answers that a second program gave, written apart from this one from the document. */
+/** Long mixed runs with the answers that two other programs gave, each written from the document apart from this one. */
 public final class RecordedRunsTest {
     private static final Check C = new Check();
 
@@ -17,21 +16,26 @@ public final class RecordedRunsTest {
                 methods.put(m.getName(), m);
             }
         }
-        List<String> lines = Files.readAllLines(Path.of("src", "test", "resources", "runs.txt"));
+        C.is("there are runs", goOver("runs.txt", methods) >= 50, true);
+        C.is("there are runs of the second", goOver("runs-second.txt", methods) >= 30, true);
+        C.end();
+    }
+
+    /** How many runs a file has. */
+    private static int goOver(String file, Map<String, Method> methods) throws Exception {
         BreedingHouse house = null;
         int run = 0;
-        for (String line : lines) {
+        for (String line : Files.readAllLines(Path.of("src", "test", "resources", file))) {
             if (line.equals("new")) {
                 house = new BreedingHouse();
                 run++;
             } else {
                 int at = line.indexOf(" = ");
-                C.is("run " + run + ": " + line.substring(0, at), call(house, methods, line.substring(0, at)),
-                        line.substring(at + 3));
+                C.is(file + " run " + run + ": " + line.substring(0, at),
+                        call(house, methods, line.substring(0, at)), line.substring(at + 3));
             }
         }
-        C.is("there are runs", run >= 50, true);
-        C.end();
+        return run;
     }
 
     private static String call(BreedingHouse house, Map<String, Method> methods, String text) throws Exception {

@@ -220,6 +220,10 @@ public final class UnderstandingEdgesTest {
         Check.fill(h, 599);
         C.is("the 600th", h.search(1), 599);
         C.fails("the 601st", Check.STATE, () -> h.search(1));
+        C.about("Promise 3", "IllegalStateException: there are 600 BIRTHS (here and below).");
+        h.add(0, 0, 0, 1, 1, false);
+        C.fails("where none would be found, too", Check.STATE, () -> h.search(5));
+        C.is("600 are there", h.births(), 600);
     }
 
     private static void searchSizes() {
