@@ -5,7 +5,7 @@ import java.nio.file.Path;
 import java.util.HashMap;
 import java.util.Map;
 
-/** Long mixed runs with the answers that two other programs gave, each written from the document apart from this one. */
+/** Long mixed runs with the answers that two other, slower programs of the document gave. */
 public final class RecordedRunsTest {
     private static final Check C = new Check();
 
